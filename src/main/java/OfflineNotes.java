@@ -745,24 +745,24 @@ public final class OfflineNotes {
         }
 
         void putTag(int replica, int tag) {
-            clearTag(tag);
-            cells[replica]++;
-            setDot(TAG_DOTS + tag * MAX_REPLICAS + replica, cells[replica], 0);
+            putNewDot(TAG_DOTS + tag * MAX_REPLICAS, replica, 0);
         }
 
         void clearTag(int tag) {
-            clearDotsFrom(TAG_DOTS + tag * MAX_REPLICAS);
+            for (int by = 0; by < MAX_REPLICAS; by++) {
+                setDot(TAG_DOTS + tag * MAX_REPLICAS + by, 0, 0);
+            }
         }
 
         void putEntry(int replica, int register, int value) {
-            clearDotsFrom(ENTRY_DOTS + register * MAX_REPLICAS);
-            cells[replica]++;
-            setDot(ENTRY_DOTS + register * MAX_REPLICAS + replica, cells[replica], value);
+            putNewDot(ENTRY_DOTS + register * MAX_REPLICAS, replica, value);
         }
 
-        private void clearDotsFrom(int first) {
+        private void putNewDot(int first, int replica, int value) {
+            cells[replica]++;
             for (int by = 0; by < MAX_REPLICAS; by++) {
-                setDot(first + by, 0, 0);
+                boolean isNew = by == replica;
+                setDot(first + by, isNew ? cells[replica] : 0, isNew ? value : 0);
             }
         }
     }

@@ -215,6 +215,10 @@ public final class PromiseTests {
         Texts.error(notes, "replicas 2 2 2; add 0 a; send 0; add 1 b; merge 0 2");
         CHECKS.equal("replicas after an error in a late line", notes.replicaCount(), 3);
         CHECKS.equal("messages after an error in a late line", notes.messageCount(), 1);
+        Texts.load(notes, "replicas 4 0 0; add 3 n");
+        Texts.error(notes, "replicas 2 2 2; add 0 a; send 0; add 1 b; merge 0 2");
+        CHECKS.equal("replicas after a load and an error", notes.replicaCount(), 4);
+        CHECKS.equal("tags after a load and an error", Texts.tags(notes, 3), "n");
     }
 
     private static void promise3LoadReadsTheGrammar() {
@@ -274,6 +278,8 @@ public final class PromiseTests {
             {"replicas 1 1 1;inc 0 0", "1@22"}, {"replicas 1 1 1;inc 0 0;", "1@22"}, {"replicas 1 1 1;inc a 0 1", "1@19"},
             {"replicas 1 1 1;inc 0 0 1 1", "1@25"}, {"replicas 1 1 1;add 0 1", "1@21"}, {"replicas 1 1 1;add 0 q", "1@21"},
             {"replicas 1 1 1;add 0 z", "1@21"}, {"replicas 1 1 1;add 0 ab", "1@21"}, {"replicas 1 1 1;add 0 aa", "1@21"},
+            {"replicas 1 1 1;add 0 az", "1@21"}, {"replicas 1 1 1;add 0 a0", "1@22"}, {"replicas 1 1 1;bdd 0 a", "1@15"},
+            {"seplicas 1 1 1", "1@0"}, {"replicat 1 1 1", "1@0"},
             {"replicas 1 1 1;add a 0", "1@19"}, {"replicas 1 1 1;add 0 A", "1@21"}, {"replicas 1 1 1;remove 0 q", "1@24"},
             {"replicas 1 1 1;remove 0 7", "1@24"}, {"replicas 1 1 1;send", "1@19"}, {"replicas 1 1 1;send 0 0", "1@22"},
             {"replicas 1 1 1;merge 0", "1@22"}, {"replicas 1 1 1;send 0;deliver 0", "1@31"}});
@@ -521,6 +527,9 @@ public final class PromiseTests {
         OfflineNotes all = Texts.loaded("replicas 1 0 0");
         CHECKS.equal("tagCount of none", all.tagCount(0), 0);
         CHECKS.noIndex("tagAt of none", () -> all.tagAt(0, 0));
+        OfflineNotes written = Texts.loaded("replicas 2 0 4; write 0 0 9; write 0 3 9; add 0 p; merge 1 0; remove 1 p");
+        CHECKS.noIndex("tagAt finds no register", () -> written.tagAt(0, 1));
+        CHECKS.noIndex("tagAt of none beside registers", () -> written.tagAt(1, 0));
         for (int tag = 15; tag >= 0; tag--) {
             all.addTag(0, tag);
         }
@@ -554,6 +563,10 @@ public final class PromiseTests {
         notes.write(0, 3, 7);
         CHECKS.equal("greatestValue after a write", notes.greatestValue(0, 3), 7);
         CHECKS.equal("entryValue after a write", notes.entryValue(0, 3, 1), OfflineNotes.NONE);
+        OfflineNotes next = Texts.loaded("replicas 4 0 4; write 0 0 3; write 0 1 4; write 0 3 5; add 0 p; write 0 2 6");
+        for (int register = 0; register < 4; register++) {
+            CHECKS.equal("greatestValue beside others", next.greatestValue(0, register), new int[] {3, 4, 6, 5}[register]);
+        }
         throwsBeyond("entryCount of a replica", 0, 3, replica -> notes.entryCount(replica, 0));
         throwsBeyond("entryCount of a register", 0, 3, register -> notes.entryCount(0, register));
         throwsBeyond("entryValue of a replica", 0, 3, replica -> notes.entryValue(replica, 0, 0));
@@ -591,6 +604,8 @@ public final class PromiseTests {
         CHECKS.equal("unseenDots of many replicas", notes.unseenDots(1, 3), 4);
         OfflineNotes dead = Texts.loaded("replicas 2 0 1; add 0 a; remove 0 a; write 0 0 1; write 0 0 2");
         CHECKS.equal("unseenDots that are not live", dead.unseenDots(0, 1), 3);
+        OfflineNotes counted = Texts.loaded("replicas 4 1 0; inc 0 0 7; add 0 a");
+        CHECKS.equal("unseenDots are no sums", counted.unseenDots(0, 1), 1);
         throwsBeyond("unseenDots from", 0, 3, from -> notes.unseenDots(from, 0));
         throwsBeyond("unseenDots to", 0, 3, to -> notes.unseenDots(0, to));
     }
@@ -629,6 +644,9 @@ public final class PromiseTests {
         CHECKS.equal("nothing is gained by asking", Texts.tags(notes, 0), "abc");
         notes.merge(0, 1);
         CHECKS.equal("tags after the merge", Texts.tags(notes, 0), "bcdp");
+        OfflineNotes written = Texts.loaded("replicas 2 0 1; write 0 0 9; add 0 b; add 1 p");
+        CHECKS.equal("tagsGained has no registers", written.tagsGained(1, 0), 1);
+        CHECKS.equal("tagsLost has no registers", written.tagsLost(0, 1), 0);
         throwsBeyond("tagsGained target", 0, 2, target -> notes.tagsGained(target, 0));
         throwsBeyond("tagsGained source", 0, 2, source -> notes.tagsGained(0, source));
         throwsBeyond("tagsLost target", 0, 2, target -> notes.tagsLost(target, 0));
@@ -648,6 +666,10 @@ public final class PromiseTests {
         OfflineNotes removed = Texts.loaded("replicas 3 0 2; add 0 a; write 0 0 1; write 0 1 1; merge 2 0; remove 2 a;"
                 + " write 2 0 5; write 1 1 1");
         CHECKS.equal("mergedTags after a removal", removed.mergedTags(), 0);
+        removed.addTag(1, 4);
+        CHECKS.equal("mergedTags after an addition", removed.mergedTags(), 1);
+        removed.undo();
+        CHECKS.equal("mergedTags after undo", removed.mergedTags(), 0);
         CHECKS.equal("mergedConflicts after a later write", removed.mergedConflicts(), 1);
         CHECKS.noIndex("mergedValue without counters", () -> removed.mergedValue(0));
         OfflineNotes alone = Texts.loaded("replicas 1 1 1; add 0 a; add 0 b; inc 0 0 3; write 0 0 1");
@@ -661,6 +683,9 @@ public final class PromiseTests {
         notes.addTag(0, 0);
         notes.write(3, 3, 1);
         CHECKS.equal("convergenceErrors later", notes.convergenceErrors(), 0);
+        notes.undo();
+        notes.undo();
+        CHECKS.equal("convergenceErrors after undo", notes.convergenceErrors(), 0);
         CHECKS.equal("convergenceErrors of one", Texts.loaded("replicas 1 0 0; add 0 a").convergenceErrors(), 0);
     }
 
@@ -687,6 +712,11 @@ public final class PromiseTests {
         CHECKS.equalDouble("completeShare after a removal", notes.completeShare(), 1.0f / 3.0f);
         notes.mergeAll();
         CHECKS.equalDouble("completeShare of all", notes.completeShare(), 1.0f);
+        CHECKS.equalDouble("completeShare of the first of four",
+                Texts.loaded("replicas 4 0 0; add 0 a").completeShare(), 0.25f);
+        CHECKS.equalDouble("completeShare of the last of four",
+                Texts.loaded("replicas 4 0 0; add 3 a").completeShare(), 0.25f);
+        CHECKS.equalDouble("completeShare of all four", Texts.loaded("replicas 4 0 0").completeShare(), 1.0f);
     }
 
     private static void promise36To38Messages() {
@@ -721,6 +751,8 @@ public final class PromiseTests {
         CHECKS.equal("decrement by 1", notes.decrement(0, 3, 1), 109);
         CHECKS.equal("increments by who called", notes.increments(0, 3, 0), 100);
         CHECKS.equal("decrements by who called", notes.decrements(0, 3, 0), 1);
+        CHECKS.equal("decrements by another who called", notes.decrements(1, 3, 1), 99);
+        CHECKS.equal("decrements that are not known", notes.decrements(0, 3, 1) + notes.decrements(1, 3, 0), 0);
         CHECKS.equal("the version after counting", notes.versionEntry(0, 0), 0);
         CHECKS.equal("another counter", notes.counterValue(0, 0), 0);
         String before = world(notes);
@@ -927,6 +959,14 @@ public final class PromiseTests {
         CHECKS.equal("senders after undo", notes.senderOf(3), 3);
         CHECKS.equal("drop of all", notes.drop(0) + notes.drop(0) + notes.drop(0) + notes.drop(0), 6);
         CHECKS.noIndex("drop of none", () -> notes.drop(0));
+        OfflineNotes full = Texts.loaded("replicas 3 0 0; send 0; send 0; send 0; send 0; add 1 a; send 1; add 1 b; send 1");
+        full.drop(0);
+        full.addTag(2, 12);
+        CHECKS.equal("send after drop from six", full.send(2), 5);
+        full.deliver(4, 0);
+        CHECKS.equal("the message before the new one", Texts.tags(full, 0), "ab");
+        full.deliver(5, 0);
+        CHECKS.equal("the new message", Texts.tags(full, 0), "abm");
     }
 
     private static void promise49Restore() {
