@@ -44,7 +44,7 @@ final class Checks {
         fails(what, IllegalStateException.class, call);
     }
 
-    private void fails(String what, Class<? extends RuntimeException> due, Call call) {
+    void fails(String what, Class<? extends RuntimeException> due, Call call) {
         String got = "nothing";
         try {
             call.run();
@@ -64,9 +64,13 @@ final class Checks {
         }
     }
 
+    boolean allPassed() {
+        return failed == 0 && passed > 0;
+    }
+
     void finish() {
         System.out.println(name + ": " + passed + " passed, " + failed + " failed");
-        if (failed > 0 || passed == 0) {
+        if (!allPassed()) {
             System.exit(1);
         }
     }

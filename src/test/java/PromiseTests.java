@@ -64,43 +64,6 @@ public final class PromiseTests {
         CHECKS.finish();
     }
 
-    /** All that tells one replica's state from another, as a text. */
-    private static String state(OfflineNotes notes, int replica) {
-        StringBuilder text = new StringBuilder();
-        for (int by = 0; by < notes.replicaCount(); by++) {
-            text.append(notes.versionEntry(replica, by)).append(' ');
-            for (int counter = 0; counter < notes.counterCount(); counter++) {
-                text.append('+').append(notes.increments(replica, counter, by));
-                text.append('-').append(notes.decrements(replica, counter, by)).append(' ');
-            }
-            for (int tag = 0; tag < 16; tag++) {
-                int dot = notes.tagDot(replica, tag, by);
-                text.append(dot == 0 ? "" : (char) ('a' + tag) + "" + dot + " ");
-            }
-            for (int register = 0; register < notes.registerCount(); register++) {
-                text.append('=').append(notes.entryValue(replica, register, by)).append(' ');
-            }
-            text.append("; ");
-        }
-        return text.toString();
-    }
-
-    /** All replicas and messages, as far as it can be asked. */
-    private static String world(OfflineNotes notes) {
-        StringBuilder text = new StringBuilder();
-        for (int replica = 0; replica < notes.replicaCount(); replica++) {
-            text.append(state(notes, replica)).append('\n');
-        }
-        for (int message = 0; message < notes.messageCount(); message++) {
-            text.append("from ").append(notes.senderOf(message));
-            for (int replica = 0; replica < notes.replicaCount(); replica++) {
-                text.append(notes.isNews(message, replica) ? " news" : " known");
-            }
-            text.append('\n');
-        }
-        return text.toString();
-    }
-
     private static void throwsBeyond(String what, int first, int last, IntUnaryOperator call) {
         for (int wrong : new int[] {MIN, first - 1, last + 1, MAX}) {
             CHECKS.noIndex(what + " with " + wrong, () -> call.applyAsInt(wrong));
@@ -130,9 +93,9 @@ public final class PromiseTests {
         CHECKS.equal("counters at first", notes.counterCount(), 2);
         CHECKS.equal("registers at first", notes.registerCount(), 1);
         CHECKS.equal("messages at first", notes.messageCount(), 1);
-        CHECKS.equal("replica 0 at first", state(notes, 0), "3 +5-0 +0-0 a2 =7 ; 0 +0-0 +0-0 =-1 ; 0 +0-0 +0-0 =-1 ; ");
-        CHECKS.equal("replica 1 at first", state(notes, 1), "1 +5-0 +0-0 =-1 ; 1 +0-2 +0-0 b1 =-1 ; 0 +0-0 +0-0 =-1 ; ");
-        CHECKS.equal("replica 2 at first", state(notes, 2), "0 +0-0 +0-0 =-1 ; 0 +0-0 +0-0 =-1 ; 2 +0-0 +0-0 c2 =9 ; ");
+        CHECKS.equal("replica 0 at first", Views.state(notes, 0), "3 +5-0 +0-0 a2 =7 ; 0 +0-0 +0-0 =-1 ; 0 +0-0 +0-0 =-1 ; ");
+        CHECKS.equal("replica 1 at first", Views.state(notes, 1), "1 +5-0 +0-0 =-1 ; 1 +0-2 +0-0 b1 =-1 ; 0 +0-0 +0-0 =-1 ; ");
+        CHECKS.equal("replica 2 at first", Views.state(notes, 2), "0 +0-0 +0-0 =-1 ; 0 +0-0 +0-0 =-1 ; 2 +0-0 +0-0 c2 =9 ; ");
         CHECKS.equal("sender at first", notes.senderOf(0), 0);
         CHECKS.noIndex("the output at first", () -> notes.outputByte(0));
         CHECKS.noIndex("the input at first", () -> notes.load(1));
@@ -141,9 +104,9 @@ public final class PromiseTests {
         CHECKS.badState("slot 1 at first", () -> notes.restore(1));
         OfflineNotes same = Texts.loaded("replicas 3 2 1; inc 0 0 5; dec 1 0 2; add 0 a; add 1 b; send 0; merge 1 0;"
                 + " remove 1 a; add 0 a; write 0 0 7; write 2 0 9; add 2 c");
-        CHECKS.equal("a new object and its text", world(notes), world(same));
+        CHECKS.equal("a new object and its text", Views.world(notes), Views.world(same));
         notes.merge(0, 1);
-        CHECKS.equal("another object stays as it is", state(new OfflineNotes(), 0), state(same, 0));
+        CHECKS.equal("another object stays as it is", Views.state(new OfflineNotes(), 0), Views.state(same, 0));
     }
 
     private static void promise2Append() {
@@ -177,8 +140,8 @@ public final class PromiseTests {
         CHECKS.equal("counters after load", notes.counterCount(), 1);
         CHECKS.equal("registers after load", notes.registerCount(), 4);
         CHECKS.equal("messages after load", notes.messageCount(), 0);
-        CHECKS.equal("replica 0 after load", state(notes, 0), "0 +0-0 =-1 =-1 =-1 =-1 ; 0 +0-0 =-1 =-1 =-1 =-1 ; ");
-        CHECKS.equal("replica 1 after load", state(notes, 1), "0 +0-0 =-1 =-1 =-1 =-1 ; 1 +0-0 d1 =-1 =-1 =-1 =-1 ; ");
+        CHECKS.equal("replica 0 after load", Views.state(notes, 0), "0 +0-0 =-1 =-1 =-1 =-1 ; 0 +0-0 =-1 =-1 =-1 =-1 ; ");
+        CHECKS.equal("replica 1 after load", Views.state(notes, 1), "0 +0-0 =-1 =-1 =-1 =-1 ; 1 +0-0 d1 =-1 =-1 =-1 =-1 ; ");
         CHECKS.noIndex("a replica that is gone", () -> notes.tagCount(2));
         CHECKS.badState("undo after load", notes::undo);
         CHECKS.badState("restore(0) after load", () -> notes.restore(0));
@@ -198,7 +161,7 @@ public final class PromiseTests {
         notes.save(1);
         notes.addTag(0, 5);
         notes.writeTags(0);
-        String before = world(notes);
+        String before = Views.world(notes);
         for (int length : new int[] {MIN, -1, 21, 600, 601, MAX}) {
             CHECKS.noIndex("load(" + length + ") of 20 bytes", () -> notes.load(length));
         }
@@ -206,7 +169,7 @@ public final class PromiseTests {
         CHECKS.equal("the input after a wrong length", notes.append(0, 0, 0, 0, 0), 40);
         CHECKS.badArgument("load of an error", () -> notes.load(19));
         CHECKS.noIndex("the input after an error", () -> notes.load(1));
-        CHECKS.equal("all after an error", world(notes), before);
+        CHECKS.equal("all after an error", Views.world(notes), before);
         CHECKS.equal("the output after an error", notes.outputByte(1), 'f');
         CHECKS.equal("undo after an error", notes.undo(), 0);
         CHECKS.no("the tag after undo", notes.hasTag(0, 5));
@@ -222,11 +185,11 @@ public final class PromiseTests {
     }
 
     private static void promise3LoadReadsTheGrammar() {
-        CHECKS.equal("blanks", state(Texts.loaded("\n  replicas\n2 1   0 \n;inc 0 0 7\n; add\n\n1 p \n"), 0),
+        CHECKS.equal("blanks", Views.state(Texts.loaded("\n  replicas\n2 1   0 \n;inc 0 0 7\n; add\n\n1 p \n"), 0),
                 "0 +7-0 ; 0 +0-0 ; ");
-        CHECKS.equal("no blanks at semicolons", state(Texts.loaded("replicas 1 1 1;inc 0 0 1;write 0 0 9;add 0 p"), 0),
+        CHECKS.equal("no blanks at semicolons", Views.state(Texts.loaded("replicas 1 1 1;inc 0 0 1;write 0 0 9;add 0 p"), 0),
                 "2 +1-0 p2 =9 ; ");
-        CHECKS.equal("leading zeros", state(Texts.loaded("replicas 01 02 00; inc 00 01 09"), 0), "0 +0-0 +9-0 ; ");
+        CHECKS.equal("leading zeros", Views.state(Texts.loaded("replicas 01 02 00; inc 00 01 09"), 0), "0 +0-0 +9-0 ; ");
         OfflineNotes longest = new OfflineNotes();
         StringBuilder text = new StringBuilder("replicas 4 4 4");
         while (text.length() + 8 <= 600) {
@@ -265,7 +228,7 @@ public final class PromiseTests {
         for (String[] row : cases) {
             CHECKS.equal("the error of \"" + row[0] + "\"", Texts.error(notes, row[0]), row[1]);
         }
-        CHECKS.equal("all after errors", world(notes), world(new OfflineNotes()));
+        CHECKS.equal("all after errors", Views.world(notes), Views.world(new OfflineNotes()));
     }
 
     private static void promise4And5SyntaxErrors() {
@@ -315,7 +278,7 @@ public final class PromiseTests {
         errors(new String[][] {{"replicas 5 x", "2@9"}, {"replicas 1 1 1;inc 1", "2@19"}, {"replicas 1 1 1;inc 9x", "2@19"},
             {"replicas 9\t", "2@9"}});
         CHECKS.equal("the greatest amounts and values",
-                state(Texts.loaded("replicas 1 1 1;inc 0 0 99;dec 0 0 1;write 0 0 99"), 0), "1 +99-1 =99 ; ");
+                Views.state(Texts.loaded("replicas 1 1 1;inc 0 0 99;dec 0 0 1;write 0 0 99"), 0), "1 +99-1 =99 ; ");
     }
 
     private static void promise4And5OtherErrors() {
@@ -416,12 +379,12 @@ public final class PromiseTests {
         OfflineNotes removal = Texts.loaded("replicas 2 0 0; add 0 a; merge 1 0; remove 1 a");
         CHECKS.no("a removal alone is news", removal.covers(0, 1));
         CHECKS.yes("the dot that is removed is no news", removal.covers(1, 0));
-        String before = world(notes);
+        String before = Views.world(notes);
         throwsBeyond("covers first", 0, 2, first -> one(notes.covers(first, 0)));
         throwsBeyond("covers second", 0, 2, second -> one(notes.covers(0, second)));
         throwsBeyond("areConcurrent first", 0, 2, first -> one(notes.areConcurrent(first, 0)));
         throwsBeyond("areConcurrent second", 0, 2, second -> one(notes.areConcurrent(0, second)));
-        CHECKS.equal("nothing changes by asking", world(notes), before);
+        CHECKS.equal("nothing changes by asking", Views.world(notes), before);
     }
 
     private static void promise13DifferentStates() {
@@ -655,13 +618,13 @@ public final class PromiseTests {
 
     private static void promise30To32AllMerged() {
         OfflineNotes notes = Texts.loaded(FOUR + "; dec 2 0 7; merge 3 2; add 0 d");
-        String before = world(notes);
+        String before = Views.world(notes);
         CHECKS.equal("mergedValue", notes.mergedValue(3), -90);
         CHECKS.equal("mergedValue of one replica", notes.mergedValue(0), -7);
         CHECKS.equal("mergedValue of none", notes.mergedValue(1), 0);
         CHECKS.equal("mergedTags", notes.mergedTags(), 3);
         CHECKS.equal("mergedConflicts", notes.mergedConflicts(), 1);
-        CHECKS.equal("nothing is merged by asking", world(notes), before);
+        CHECKS.equal("nothing is merged by asking", Views.world(notes), before);
         throwsBeyond("mergedValue", 0, 3, counter -> notes.mergedValue(counter));
         OfflineNotes removed = Texts.loaded("replicas 3 0 2; add 0 a; write 0 0 1; write 0 1 1; merge 2 0; remove 2 a;"
                 + " write 2 0 5; write 1 1 1");
@@ -755,7 +718,7 @@ public final class PromiseTests {
         CHECKS.equal("decrements that are not known", notes.decrements(0, 3, 1) + notes.decrements(1, 3, 0), 0);
         CHECKS.equal("the version after counting", notes.versionEntry(0, 0), 0);
         CHECKS.equal("another counter", notes.counterValue(0, 0), 0);
-        String before = world(notes);
+        String before = Views.world(notes);
         for (int amount : new int[] {MIN, -1, 0, 100, MAX}) {
             CHECKS.badArgument("increment by " + amount, () -> notes.increment(0, 0, amount));
             CHECKS.badArgument("decrement by " + amount, () -> notes.decrement(0, 0, amount));
@@ -770,7 +733,7 @@ public final class PromiseTests {
         }
         CHECKS.noIndex("increment of replica 2", () -> notes.increment(2, 0, 1));
         CHECKS.noIndex("decrement of replica 2", () -> notes.decrement(2, 0, 1));
-        CHECKS.equal("wrong counting changes nothing", world(notes), before);
+        CHECKS.equal("wrong counting changes nothing", Views.world(notes), before);
         CHECKS.equal("wrong counting is not recorded", notes.undo(), 3);
     }
 
@@ -840,10 +803,10 @@ public final class PromiseTests {
 
     private static void promise44Merge() {
         OfflineNotes notes = new OfflineNotes();
-        String source = state(notes, 0);
+        String source = Views.state(notes, 0);
         CHECKS.yes("merge of news", notes.merge(1, 0));
-        CHECKS.equal("the source of a merge", state(notes, 0), source);
-        CHECKS.equal("the target of a merge", state(notes, 1),
+        CHECKS.equal("the source of a merge", Views.state(notes, 0), source);
+        CHECKS.equal("the target of a merge", Views.state(notes, 1),
                 "3 +5-0 +0-0 a2 =7 ; 1 +0-2 +0-0 b1 =-1 ; 0 +0-0 +0-0 =-1 ; ");
         CHECKS.no("merge again", notes.merge(1, 0));
         CHECKS.no("merge of itself", notes.merge(1, 1));
@@ -879,16 +842,16 @@ public final class PromiseTests {
         CHECKS.equal("the value that replaced them", Texts.register(values, 2, 0), "13");
         OfflineNotes sums = Texts.loaded("replicas 2 1 0; inc 0 0 5; dec 0 0 2; merge 1 0; inc 0 0 5; inc 1 0 1; dec 1 0 9");
         sums.merge(1, 0);
-        CHECKS.equal("the greater sums", state(sums, 1), "0 +10-2 ; 0 +1-9 ; ");
+        CHECKS.equal("the greater sums", Views.state(sums, 1), "0 +10-2 ; 0 +1-9 ; ");
         OfflineNotes version = Texts.loaded("replicas 2 0 0; add 0 a; add 0 b; remove 0 b; merge 1 0; add 1 c; merge 0 1");
-        CHECKS.equal("the greater entries", state(version, 0), "2 a1 ; 1 c1 ; ");
+        CHECKS.equal("the greater entries", Views.state(version, 0), "2 a1 ; 1 c1 ; ");
     }
 
     private static void promise45MergeAll() {
         OfflineNotes notes = Texts.loaded(FOUR);
         CHECKS.equal("mergeAll of four", notes.mergeAll(), 4);
         CHECKS.equal("states after it", notes.differentStates(), 1);
-        CHECKS.equal("a state after it", state(notes, 2), "2 +0-0 +0-0 +0-0 +9-0 =-1 =-1 =-1 =-1 ; "
+        CHECKS.equal("a state after it", Views.state(notes, 2), "2 +0-0 +0-0 +0-0 +9-0 =-1 =-1 =-1 =-1 ; "
                 + "2 +0-0 +0-0 +0-0 +0-0 a2 =-1 =-1 =-1 =20 ; 1 +0-0 +0-0 +0-0 +0-0 =-1 =-1 =-1 =5 ; "
                 + "1 +0-0 +0-0 +0-0 +0-99 p1 =-1 =-1 =-1 =-1 ; ");
         CHECKS.equal("mergeAll again", notes.mergeAll(), 0);
@@ -923,7 +886,7 @@ public final class PromiseTests {
         CHECKS.no("deliver to the sender", notes.deliver(0, 0));
         CHECKS.equal("tags of the sender", Texts.tags(notes, 0), "b");
         CHECKS.yes("deliver of the later message", notes.deliver(1, 1));
-        CHECKS.equal("what it brings", state(notes, 1), "3 +3-0 a1 b2 =8 ; 0 +0-0 =-1 ; 0 +0-0 =-1 ; ");
+        CHECKS.equal("what it brings", Views.state(notes, 1), "3 +3-0 a1 b2 =8 ; 0 +0-0 =-1 ; 0 +0-0 =-1 ; ");
         CHECKS.no("deliver of the earlier one", notes.deliver(0, 1));
         CHECKS.no("deliver again", notes.deliver(1, 1));
         CHECKS.equal("messages stay", notes.messageCount(), 2);
@@ -972,25 +935,25 @@ public final class PromiseTests {
     private static void promise49Restore() {
         OfflineNotes notes = new OfflineNotes();
         notes.save(1);
-        String before = world(notes);
+        String before = Views.world(notes);
         notes.mergeAll();
         notes.send(2);
         notes.send(1);
-        String later = world(notes);
+        String later = Views.world(notes);
         CHECKS.badState("restore of an empty slot", () -> notes.restore(0));
         for (int wrong : new int[] {MIN, -1, 2, MAX}) {
             CHECKS.noIndex("restore(" + wrong + ")", () -> notes.restore(wrong));
         }
         CHECKS.equal("restore", notes.restore(1), 1);
-        CHECKS.equal("all after restore", world(notes), before);
+        CHECKS.equal("all after restore", Views.world(notes), before);
         CHECKS.equal("undo of restore", notes.undo(), 3);
-        CHECKS.equal("all after undo", world(notes), later);
+        CHECKS.equal("all after undo", Views.world(notes), later);
         notes.addTag(0, 9);
         CHECKS.equal("restore again", notes.restore(1), 1);
         notes.addTag(0, 9);
         notes.drop(0);
         CHECKS.equal("a saved state stays as it is", notes.restore(1), 1);
-        CHECKS.equal("all after all", world(notes), before);
+        CHECKS.equal("all after all", Views.world(notes), before);
     }
 
     // ---- promises 50 to 54
@@ -1000,12 +963,12 @@ public final class PromiseTests {
         CHECKS.badState("undo of nothing", notes::undo);
         String[] worlds = new String[14];
         for (int change = 0; change < 13; change++) {
-            worlds[change] = world(notes);
+            worlds[change] = Views.world(notes);
             notes.addTag(change % 3, change);
         }
         for (int left = 9; left >= 0; left--) {
             CHECKS.equal("undo", notes.undo(), left);
-            CHECKS.equal("all after undo", world(notes), worlds[left + 3]);
+            CHECKS.equal("all after undo", Views.world(notes), worlds[left + 3]);
         }
         CHECKS.badState("undo of an eleventh change", notes::undo);
         notes.addTag(0, 15);
@@ -1015,23 +978,23 @@ public final class PromiseTests {
         CHECKS.equal("undo after undo and change", notes.undo(), 1);
         CHECKS.yes("a change that is not undone", notes.hasTag(0, 15));
         CHECKS.equal("undo of the first one", notes.undo(), 0);
-        CHECKS.equal("all after that", world(notes), worlds[3]);
+        CHECKS.equal("all after that", Views.world(notes), worlds[3]);
     }
 
     private static void promise50UndoTakesBackEachChange() {
         OfflineNotes notes = new OfflineNotes();
         notes.save(0);
         notes.addTag(1, 7);
-        String before = world(notes);
+        String before = Views.world(notes);
         Checks.Call[] changes = {() -> notes.increment(0, 0, 9), () -> notes.decrement(2, 1, 9),
             () -> notes.addTag(0, 0), () -> notes.removeTag(1, 1), () -> notes.write(0, 0, 3), () -> notes.merge(0, 2),
             () -> notes.mergeAll(), () -> notes.send(1), () -> notes.deliver(0, 2), () -> notes.drop(0),
             () -> notes.restore(0)};
         for (int i = 0; i < changes.length; i++) {
             changes[i].run();
-            CHECKS.no("change " + i + " alters something", world(notes).equals(before));
+            CHECKS.no("change " + i + " alters something", Views.world(notes).equals(before));
             CHECKS.equal("undo of change " + i, notes.undo(), 1);
-            CHECKS.equal("all after undo of change " + i, world(notes), before);
+            CHECKS.equal("all after undo of change " + i, Views.world(notes), before);
         }
         notes.writeTags(1);
         notes.append(0x61616161, 0, 0, 0, 0);
@@ -1072,11 +1035,11 @@ public final class PromiseTests {
 
     private static void promise51Save() {
         OfflineNotes notes = new OfflineNotes();
-        String first = world(notes);
+        String first = Views.world(notes);
         CHECKS.equal("save", notes.save(0), 1);
         notes.send(1);
         notes.addTag(2, 6);
-        String second = world(notes);
+        String second = Views.world(notes);
         CHECKS.equal("save in the other slot", notes.save(1), 2);
         CHECKS.equal("save is no change", notes.undo(), 1);
         notes.drop(0);
@@ -1085,14 +1048,14 @@ public final class PromiseTests {
             CHECKS.noIndex("save(" + wrong + ")", () -> notes.save(wrong));
         }
         CHECKS.equal("restore of slot 1", notes.restore(1), 2);
-        CHECKS.equal("all of slot 1", world(notes), second);
+        CHECKS.equal("all of slot 1", Views.world(notes), second);
         CHECKS.equal("restore of slot 0", notes.restore(0), 1);
-        CHECKS.equal("all of slot 0", world(notes), first);
+        CHECKS.equal("all of slot 0", Views.world(notes), first);
         notes.restore(1);
         CHECKS.equal("save over a saved state", notes.save(0), 2);
         notes.drop(1);
         CHECKS.equal("restore of what replaced it", notes.restore(0), 2);
-        CHECKS.equal("all of what replaced it", world(notes), second);
+        CHECKS.equal("all of what replaced it", Views.world(notes), second);
     }
 
     private static void promise52WriteTags() {

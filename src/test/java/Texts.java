@@ -2,6 +2,9 @@ import java.nio.charset.StandardCharsets;
 
 /** Brings texts into an object's input buffer, and its output buffer into a text. */
 final class Texts {
+    /** Four spaces, as a number for append. */
+    static final int SPACES = 0x20202020;
+
     private Texts() {
     }
 
