@@ -205,6 +205,12 @@ final class ChangeBoundaries {
         due.equal("the register", notes.entryValue(3, 0, 0), 5);
         due.equal("the tag of another replica", notes.liveDots(0, 15), 4);
         due.equal("the entries of the version vector", notes.versionEntry(3, 3) * 10 + notes.versionEntry(3, 0), 13);
+        for (int tag = 0; tag < 16; tag++) {
+            OfflineNotes crowded = Worlds.crowded();
+            String withoutTag = Views.state(crowded, 1).replaceAll((char) ('a' + tag) + "[0-9]+ ", "");
+            crowded.removeTag(1, tag);
+            due.equal("all else after removeTag of " + tag, Views.state(crowded, 1), withoutTag);
+        }
     }
 
     private static void removedFrom1To4(Checks due) {

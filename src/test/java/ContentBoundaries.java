@@ -138,7 +138,7 @@ final class ContentBoundaries {
     }
 
     private static void tagCountsFrom0To16(Checks due) {
-        OfflineNotes notes = Texts.loaded("replicas 2 0 1; write 0 0 3");
+        OfflineNotes notes = Texts.loaded("replicas 2 4 1; write 0 0 3; inc 0 0 1; dec 0 3 1");
         due.equal("tagCount of none", notes.tagCount(0), 0);
         for (int tag = 15; tag >= 0; tag--) {
             notes.addTag(0, tag);
@@ -159,7 +159,7 @@ final class ContentBoundaries {
         due.equal("tagAt 2", notes.tagAt(0, 2), 15);
         notes.removeTag(0, 0);
         due.equal("tagAt 0 after the removal", notes.tagAt(0, 0), 7);
-        OfflineNotes all = Worlds.full();
+        OfflineNotes all = Worlds.crowded();
         for (int index = 0; index < 16; index++) {
             due.equal("tagAt of all", all.tagAt(3, index), index);
         }
@@ -172,9 +172,9 @@ final class ContentBoundaries {
         Refusals.range(due, Refusals.NO_INDEX, () -> Worlds.empty(2, 1, 1), 0, -1, (notes, index) -> notes.tagAt(0, index));
     }
 
-    /** Registers are written beside the tags, since their dots must not count. */
+    /** Registers are written and counters used beside the tags, since they must not count. */
     private static OfflineNotes threeTags() {
-        return Texts.loaded("replicas 2 1 4; add 0 a; add 0 h; add 0 p; write 0 0 9; write 0 3 9; add 1 c");
+        return Texts.loaded("replicas 2 4 4; add 0 a; add 0 h; add 0 p; write 0 0 9; write 0 3 9; dec 0 3 1; add 1 c");
     }
 
     // ---- registers
@@ -224,6 +224,12 @@ final class ContentBoundaries {
             due.equal("greatestValue, by replica " + greatest, notes.greatestValue(0, 3), 99);
             due.equal("greatestValue of four zeros", notes.greatestValue(3, 2), 0);
         }
+        for (int register = 0; register < 4; register++) {
+            OfflineNotes crowded = Worlds.crowded();
+            crowded.write(1, register, 0);
+            due.equal("greatestValue of 0 beside greater ones", crowded.greatestValue(1, register), 0);
+            due.equal("greatestValue before the write", crowded.greatestValue(0, register), 30 + register);
+        }
     }
 
     private static void greatestOfNone(Checks due) {
@@ -253,10 +259,12 @@ final class ContentBoundaries {
 
     private static void conflictsFrom0To4(Checks due) {
         OfflineNotes notes = Worlds.empty(2, 0, 4);
-        notes.addTag(0, 0);
-        notes.addTag(1, 0);
+        for (int tag = 0; tag < 16; tag++) {
+            notes.addTag(0, tag);
+            notes.addTag(1, tag);
+        }
         notes.mergeAll();
-        due.equal("conflicts of a tag with two dots", notes.conflicts(0), 0);
+        due.equal("conflicts of tags with two dots", notes.conflicts(0), 0);
         for (int register = 0; register < 4; register++) {
             notes.write(0, register, 1);
             notes.write(1, register, 1);

@@ -2,7 +2,7 @@
 final class InputBoundaries {
     private static final int MIN = Integer.MIN_VALUE;
     private static final int MAX = Integer.MAX_VALUE;
-    private static final int[] HIGH_BYTES = {0x80, 0xff, 'x', ';', 0};
+    private static final int[] SIGNS = {0x80, 0xff, 'x', ';', 0};
 
     private InputBoundaries() {
     }
@@ -18,12 +18,12 @@ final class InputBoundaries {
                 + " add 1 b; send 0; merge 1 0; remove 1 a; add 0 a; write 0 0 7; write 2 0 9; add 2 c\" describes,"
                 + " and its buffers are empty.", InputBoundaries::newObjectIsAsTheText);
         sentences.test(1, "and its buffers are empty", InputBoundaries::newBuffersAreEmpty);
+        sentences.test(1, "An object is used for at most 512 calls after it has been made; what later calls answer is free.",
+                InputBoundaries::callsUpTo512);
         sentences.test(1, "`NONE = -1`", due -> due.equal("NONE", OfflineNotes.NONE, -1));
     }
 
     private static void addAppend(Sentences sentences) {
-        sentences.test(2, "An object is used for at most 512 calls after it has been made; what later calls answer is free.",
-                InputBoundaries::callsUpTo512);
         sentences.test(2, "Appends 20 bytes to the input buffer", InputBoundaries::appendAdds20Bytes);
         sentences.test(2, "the four bytes of each parameter in order, most significant byte first.",
                 InputBoundaries::appendKeepsEachByte);
@@ -106,7 +106,7 @@ final class InputBoundaries {
     }
 
     private static void appendKeepsEachByte(Checks due) {
-        for (int sign : HIGH_BYTES) {
+        for (int sign : SIGNS) {
             for (int at = 0; at < 20; at++) {
                 byte[] row = Texts.bytes(" ".repeat(20));
                 row[at] = (byte) sign;

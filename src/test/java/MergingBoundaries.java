@@ -8,6 +8,7 @@ final class MergingBoundaries {
     static void addTo(Sentences sentences) {
         addDeltas(sentences);
         addLooksAhead(sentences);
+        addNothingChanges(sentences);
         addRules(sentences);
     }
 
@@ -45,6 +46,41 @@ final class MergingBoundaries {
                 + " by the number of replicas as a float.", MergingBoundaries::sharesFrom0To1);
     }
 
+    private static void addNothingChanges(Sentences sentences) {
+        addQuestion(sentences, 26, notes -> notes.unseenDots(0, 1));
+        addQuestion(sentences, 27, notes -> notes.deltaSize(0, 1));
+        addQuestion(sentences, 28, notes -> notes.tagsGained(0, 1));
+        addQuestion(sentences, 29, notes -> notes.tagsLost(0, 1));
+        addQuestion(sentences, 30, notes -> notes.mergedValue(0));
+        addQuestion(sentences, 31, OfflineNotes::mergedTags);
+        addQuestion(sentences, 32, OfflineNotes::mergedConflicts);
+        addQuestion(sentences, 33, OfflineNotes::convergenceErrors);
+        addQuestion(sentences, 34, OfflineNotes::meanTags);
+        addQuestion(sentences, 35, OfflineNotes::completeShare);
+    }
+
+    private static void addQuestion(Sentences sentences, int promise, Refusals.Use question) {
+        sentences.test(promise, "---- merging: nothing changes.", due -> {
+            Refusals.unchanged(due, Worlds::busy, question);
+            Refusals.unchanged(due, OfflineNotes::new, question);
+            Refusals.unchanged(due, MergingBoundaries::fourConcurrent, question);
+        });
+    }
+
+    /** Each of four replicas knows something that no other one knows, and lacks what a message and the slots have. */
+    private static OfflineNotes fourConcurrent() {
+        OfflineNotes notes = Worlds.crowded();
+        notes.send(1);
+        notes.save(0);
+        for (int replica = 0; replica < 4; replica++) {
+            notes.addTag(replica, 15 - replica);
+            notes.removeTag(replica, replica);
+            notes.write(replica, replica, 9);
+            notes.increment(replica, 0, 1 + replica);
+        }
+        return notes;
+    }
+
     private static void addRules(Sentences sentences) {
         sentences.test(44, "the source stays as it is.", MergingBoundaries::sourceStays);
         sentences.test(44, "The sum of increments and the sum of decrements of each replica for each counter become the"
@@ -72,8 +108,14 @@ final class MergingBoundaries {
         due.equal("unseenDots of none", notes.unseenDots(1, 3), 0);
         notes.addTag(0, 0);
         notes.removeTag(0, 0);
+        due.equal("unseenDots of the first one", notes.unseenDots(0, 3), 1);
         notes.mergeAll();
         due.equal("unseenDots after all is merged", notes.unseenDots(0, 1) + notes.unseenDots(1, 0), 0);
+        OfflineNotes full = Worlds.full();
+        full.increment(0, 0, 99);
+        for (int replica = 0; replica < 4; replica++) {
+            due.equal("unseenDots of replica " + replica, full.unseenDots(replica, (replica + 1) % 4), 20);
+        }
     }
 
     private static void unseenDotsThrows(Checks due) {
@@ -149,8 +191,9 @@ final class MergingBoundaries {
     // ---- looks ahead
 
     private static void gainedFrom0To16(Checks due) {
-        OfflineNotes notes = Worlds.empty(3, 0, 1);
+        OfflineNotes notes = Worlds.empty(3, 4, 1);
         notes.write(0, 0, 1);
+        notes.decrement(0, 3, 1);
         for (int tag = 15; tag >= 0; tag--) {
             due.equal("tagsGained", notes.tagsGained(2, 0), 15 - tag);
             notes.addTag(0, tag);
@@ -206,8 +249,9 @@ final class MergingBoundaries {
     }
 
     private static void mergedTagsFrom0To16(Checks due) {
-        OfflineNotes notes = Worlds.empty(4, 0, 4);
+        OfflineNotes notes = Worlds.empty(4, 4, 4);
         notes.write(3, 3, 1);
+        notes.decrement(3, 3, 1);
         due.equal("mergedTags of none", notes.mergedTags(), 0);
         for (int tag = 0; tag < 16; tag++) {
             notes.addTag(tag % 4, tag);
@@ -247,6 +291,12 @@ final class MergingBoundaries {
                 + " write 2 0 6; write 0 0 7; inc 1 0 3");
         due.equal("convergenceErrors of concurrent ones", notes.convergenceErrors(), 0);
         due.equal("the states after the question", notes.differentStates(), 3);
+        notes.addTag(2, 15);
+        due.equal("convergenceErrors after a change", notes.convergenceErrors(), 0);
+        notes.undo();
+        due.equal("convergenceErrors after its undo", notes.convergenceErrors(), 0);
+        Texts.load(notes, "replicas 1 0 0");
+        due.equal("convergenceErrors after load", notes.convergenceErrors(), 0);
     }
 
     private static void meansFrom0To16(Checks due) {

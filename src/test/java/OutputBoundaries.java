@@ -73,8 +73,9 @@ final class OutputBoundaries {
             due.equal("the tags from " + tag, Texts.tags(notes, 0), "abcdefghijklmnop".substring(tag));
         }
         for (int tag = 0; tag < 16; tag++) {
-            OfflineNotes alone = Worlds.empty(2, 0, 4);
+            OfflineNotes alone = Worlds.empty(2, 4, 4);
             alone.write(1, 0, 5);
+            alone.decrement(1, 3, 5);
             alone.addTag(1, tag);
             due.equal("the only tag", Texts.tags(alone, 1), "" + (char) ('a' + tag));
             due.equal("its byte", alone.outputByte(0), 97 + tag);

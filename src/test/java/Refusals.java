@@ -1,6 +1,6 @@
 import java.util.function.Supplier;
 
-/** Ranges of arguments: the last that are answered, the first that are refused, and that nothing has changed then. */
+/** Calls that must change nothing: those on the wrong side of a range of arguments, and questions. */
 final class Refusals {
     interface Use {
         Object of(OfflineNotes notes);
@@ -26,6 +26,16 @@ final class Refusals {
         OfflineNotes sending = made.get();
         due.fails(what, why, () -> call.of(sending));
         due.equal("the messages after " + what, Views.messages(sending), Views.messages(made.get()));
+    }
+
+    /** A question, behind which an object is compared with another one that has not been asked. */
+    static void unchanged(Checks due, Supplier<OfflineNotes> made, Use question) {
+        OfflineNotes notes = made.get();
+        answered(due, notes, "the question", question);
+        due.equal("all after the question", Views.everything(notes), Views.everything(made.get()));
+        OfflineNotes sending = made.get();
+        answered(due, sending, "the question", question);
+        due.equal("the messages after the question", Views.messages(sending), Views.messages(made.get()));
     }
 
     static void answered(Checks due, OfflineNotes notes, String what, Use call) {

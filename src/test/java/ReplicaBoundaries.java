@@ -252,6 +252,11 @@ final class ReplicaBoundaries {
             due.equal("counterValue of all", notes.counterValue(replica, 3), 15 - 112);
             due.equal("counterValue of another counter", notes.counterValue(replica, 2), 0);
         }
+        OfflineNotes crowded = Worlds.crowded();
+        for (int counter = 0; counter < 4; counter++) {
+            int value = 4 * (50 + 10 * counter) + 6 - 4 * (1 + 8 * counter) - 12;
+            due.equal("counterValue beside others", crowded.counterValue(3, counter), value);
+        }
     }
 
     private static void valuesAroundZero(Checks due) {

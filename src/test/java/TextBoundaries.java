@@ -294,6 +294,30 @@ final class TextBoundaries {
             {HEAD + "merge a", "1@21"}, {HEAD + "merge 0 ;", "1@23"}, {HEAD + "merge 0 1 0", "1@25"}, {HEAD + "send a", "1@20"},
             {HEAD + "send 0 0", "1@22"}, {HEAD + "send 0;deliver a", "1@30"}, {HEAD + "send 0;deliver 0 a", "1@32"},
             {HEAD + "send 0;deliver 0 0 0", "1@34"}});
+        kind1AlmostTheWord(due);
+    }
+
+    /** Words that differ from a line's word by one letter, at its start, in it, or at its end. */
+    private static void kind1AlmostTheWord(Checks due) {
+        String[] words = {"inc", "dec", "add", "remove", "write", "merge", "send", "deliver"};
+        String text = "replicas 2 1 1;add 0 a;send 0;";
+        for (String word : words) {
+            String rest = word.equals("inc") || word.equals("dec") || word.equals("write") ? " 0 0 1"
+                    : word.equals("add") || word.equals("remove") ? " 0 a" : word.equals("send") ? " 0" : " 0 0";
+            loads(due, text + word + rest);
+            for (String almost : almost(word)) {
+                errors(due, new String[][] {{text + almost + rest, "1@" + text.length()}});
+            }
+        }
+        for (String almost : almost("replicas")) {
+            errors(due, new String[][] {{almost + " 2 1 1", "1@0"}});
+        }
+    }
+
+    private static String[] almost(String word) {
+        int last = word.length() - 1;
+        return new String[] {"z" + word.substring(1), word.charAt(0) + "z" + word.substring(2), word.substring(0, last) + "z",
+            word.substring(1), word.substring(0, last), word + "z", word + word.charAt(last), "z" + word};
     }
 
     private static void kind1NoTag(Checks due) {

@@ -66,6 +66,19 @@ final class Worlds {
         return Texts.loaded("replicas " + replicas + " " + counters + " " + registers);
     }
 
+    /** As full, but each replica has counted with all counters, and all is merged: nothing is zero or absent. */
+    static OfflineNotes crowded() {
+        OfflineNotes notes = full();
+        for (int replica = 0; replica < 4; replica++) {
+            for (int counter = 0; counter < 4; counter++) {
+                notes.increment(replica, counter, 50 + 10 * counter + replica);
+                notes.decrement(replica, counter, 1 + 8 * counter + 2 * replica);
+            }
+        }
+        notes.mergeAll();
+        return notes;
+    }
+
     /** Each of four replicas has added all tags and written all registers, and knows nothing of the others. */
     static OfflineNotes full() {
         OfflineNotes notes = empty(4, 4, 4);
