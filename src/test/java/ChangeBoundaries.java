@@ -21,12 +21,12 @@ final class ChangeBoundaries {
         sentences.test(39, NO_COUNTER, ChangeBoundaries::incrementThrows);
         sentences.test(39, "Throws `IllegalArgumentException` if amount is out of range", due -> Refusals.range(due,
                 Refusals.BAD_ARGUMENT, Worlds::busy, 1, 99, (notes, amount) -> notes.increment(0, 0, amount)));
-        sentences.test(39, FIRST_LISTED, due -> wrongIndexAndNumber(due, OfflineNotes::increment, 0));
+        sentences.test(39, FIRST_LISTED, due -> wrongIndexAndNumber(due, Notes::increment, 0));
         sentences.test(40, "`amount`: 1 to 99", ChangeBoundaries::decrementsBy1To99);
         sentences.test(40, NO_COUNTER, ChangeBoundaries::decrementThrows);
         sentences.test(40, "Throws `IllegalArgumentException` if amount is out of range", due -> Refusals.range(due,
                 Refusals.BAD_ARGUMENT, Worlds::busy, 1, 99, (notes, amount) -> notes.decrement(0, 0, amount)));
-        sentences.test(40, FIRST_LISTED, due -> wrongIndexAndNumber(due, OfflineNotes::decrement, 0));
+        sentences.test(40, FIRST_LISTED, due -> wrongIndexAndNumber(due, Notes::decrement, 0));
     }
 
     private static void addTags(Sentences sentences) {
@@ -58,7 +58,7 @@ final class ChangeBoundaries {
                 ChangeBoundaries::writeThrows);
         sentences.test(43, "Throws `IllegalArgumentException` if value is out of range", due -> Refusals.range(due,
                 Refusals.BAD_ARGUMENT, Worlds::busy, 0, 99, (notes, value) -> notes.write(0, 0, value)));
-        sentences.test(43, FIRST_LISTED, due -> wrongIndexAndNumber(due, OfflineNotes::write, -1));
+        sentences.test(43, FIRST_LISTED, due -> wrongIndexAndNumber(due, Notes::write, -1));
     }
 
     private static void addMerging(Sentences sentences) {
@@ -72,7 +72,7 @@ final class ChangeBoundaries {
     }
 
     private interface Change {
-        int of(OfflineNotes notes, int replica, int place, int number);
+        int of(Notes notes, int replica, int place, int number);
     }
 
     /** The index is told before the number, whichever index it is. */
@@ -92,7 +92,7 @@ final class ChangeBoundaries {
     // ---- counting
 
     private static void incrementsBy1To99(Checks due) {
-        OfflineNotes notes = Worlds.empty(4, 4, 0);
+        Notes notes = Worlds.empty(4, 4, 0);
         int sum = 0;
         for (int amount = 1; amount <= 99; amount++) {
             sum += amount;
@@ -112,7 +112,7 @@ final class ChangeBoundaries {
     }
 
     private static void decrementsBy1To99(Checks due) {
-        OfflineNotes notes = Worlds.empty(4, 4, 0);
+        Notes notes = Worlds.empty(4, 4, 0);
         int sum = 0;
         for (int amount = 1; amount <= 99; amount++) {
             sum -= amount;
@@ -134,7 +134,7 @@ final class ChangeBoundaries {
     // ---- tags
 
     private static void nextNumbers(Checks due) {
-        OfflineNotes notes = Worlds.empty(4, 0, 1);
+        Notes notes = Worlds.empty(4, 0, 1);
         due.equal("the first dot", notes.addTag(3, 0), 1);
         due.equal("the entry after it", notes.versionEntry(3, 3), 1);
         due.equal("the second dot", notes.addTag(3, 0), 2);
@@ -152,7 +152,7 @@ final class ChangeBoundaries {
     }
 
     private static void addedAgain(Checks due) {
-        OfflineNotes notes = Texts.loaded("replicas 2 0 0; add 0 p");
+        Notes notes = Texts.loaded("replicas 2 0 0; add 0 p");
         due.equal("addTag of a present tag", notes.addTag(0, 15), 2);
         due.equal("its dot", notes.tagDot(0, 15, 0), 2);
         due.equal("tagCount after it", notes.tagCount(0), 1);
@@ -163,7 +163,7 @@ final class ChangeBoundaries {
 
     private static void onlyLiveDot(Checks due) {
         for (int dots = 0; dots <= 4; dots++) {
-            OfflineNotes notes = Texts.loaded("replicas 4 0 1;add 0 p;add 1 p;add 2 p;add 3 p;write 0 0 5");
+            Notes notes = Texts.loaded("replicas 4 0 1;add 0 p;add 1 p;add 2 p;add 3 p;write 0 0 5");
             for (int replica = 1; replica < dots; replica++) {
                 notes.merge(0, replica);
             }
@@ -178,7 +178,7 @@ final class ChangeBoundaries {
     }
 
     private static void addedFrom0To15(Checks due) {
-        OfflineNotes notes = Worlds.empty(1, 4, 4);
+        Notes notes = Worlds.empty(1, 4, 4);
         for (int tag = 0; tag <= 15; tag++) {
             due.equal("addTag", notes.addTag(0, tag), tag + 1);
             due.equal("its dot", notes.tagDot(0, tag, 0), tag + 1);
@@ -196,7 +196,7 @@ final class ChangeBoundaries {
     }
 
     private static void allDotsAreRemoved(Checks due) {
-        OfflineNotes notes = Texts.loaded("replicas 4 0 1;add 0 p;add 1 p;add 2 p;add 3 p;add 0 o;write 0 0 5");
+        Notes notes = Texts.loaded("replicas 4 0 1;add 0 p;add 1 p;add 2 p;add 3 p;add 0 o;write 0 0 5");
         notes.mergeAll();
         notes.removeTag(3, 15);
         due.equal("the dots of the tag", notes.liveDots(3, 15), 0);
@@ -206,7 +206,7 @@ final class ChangeBoundaries {
         due.equal("the tag of another replica", notes.liveDots(0, 15), 4);
         due.equal("the entries of the version vector", notes.versionEntry(3, 3) * 10 + notes.versionEntry(3, 0), 13);
         for (int tag = 0; tag < 16; tag++) {
-            OfflineNotes crowded = Worlds.crowded();
+            Notes crowded = Worlds.crowded();
             String withoutTag = Views.state(crowded, 1).replaceAll((char) ('a' + tag) + "[0-9]+ ", "");
             crowded.removeTag(1, tag);
             due.equal("all else after removeTag of " + tag, Views.state(crowded, 1), withoutTag);
@@ -215,7 +215,7 @@ final class ChangeBoundaries {
 
     private static void removedFrom1To4(Checks due) {
         for (int dots = 1; dots <= 4; dots++) {
-            OfflineNotes notes = Texts.loaded("replicas 4 0 0;add 0 a;add 1 a;add 2 a;add 3 a");
+            Notes notes = Texts.loaded("replicas 4 0 0;add 0 a;add 1 a;add 2 a;add 3 a");
             for (int replica = 1; replica < dots; replica++) {
                 notes.merge(0, replica);
             }
@@ -224,7 +224,7 @@ final class ChangeBoundaries {
     }
 
     private static void removedFrom0To15(Checks due) {
-        OfflineNotes notes = Worlds.full();
+        Notes notes = Worlds.full();
         for (int tag = 0; tag <= 15; tag++) {
             due.equal("removeTag", notes.removeTag(0, tag), 1);
             due.equal("tagCount after it", notes.tagCount(0), 15 - tag);
@@ -248,12 +248,12 @@ final class ChangeBoundaries {
                 notes -> notes.removeTag(0, 15));
         Refusals.answered(due, withoutFirstAndLast(), "removeTag of another tag", notes -> notes.removeTag(0, 14));
         Refusals.answered(due, withoutFirstAndLast(), "removeTag by another replica", notes -> notes.removeTag(2, 0));
-        Refusals.refused(due, Refusals.BAD_STATE, OfflineNotes::new, "removeTag of what another one has",
+        Refusals.refused(due, Refusals.BAD_STATE, Notes::new, "removeTag of what another one has",
                 notes -> notes.removeTag(0, 1));
     }
 
-    private static OfflineNotes withoutFirstAndLast() {
-        OfflineNotes notes = Worlds.busy();
+    private static Notes withoutFirstAndLast() {
+        Notes notes = Worlds.busy();
         notes.removeTag(0, 0);
         notes.removeTag(0, 15);
         return notes;
@@ -272,7 +272,7 @@ final class ChangeBoundaries {
     // ---- writing
 
     private static void eachValue(Checks due) {
-        OfflineNotes notes = Worlds.empty(4, 0, 4);
+        Notes notes = Worlds.empty(4, 0, 4);
         for (int value = 0; value <= 99; value++) {
             notes.write(3, 3, value);
             due.equal("the value", notes.entryValue(3, 3, 3), value);
@@ -282,7 +282,7 @@ final class ChangeBoundaries {
     }
 
     private static void leastAndGreatestValue(Checks due) {
-        OfflineNotes notes = Worlds.empty(2, 0, 1);
+        Notes notes = Worlds.empty(2, 0, 1);
         due.equal("write of 0", notes.write(0, 0, 0), 0);
         due.equal("the value 0", notes.greatestValue(0, 0), 0);
         due.equal("write of 99", notes.write(0, 0, 99), 1);
@@ -294,7 +294,7 @@ final class ChangeBoundaries {
     }
 
     private static void allEntriesAreReplaced(Checks due) {
-        OfflineNotes notes = Texts.loaded("replicas 4 0 4;write 0 3 1;write 1 3 2;write 2 3 3;write 3 3 4;write 3 2 5;add 0 p");
+        Notes notes = Texts.loaded("replicas 4 0 4;write 0 3 1;write 1 3 2;write 2 3 3;write 3 3 4;write 3 2 5;add 0 p");
         notes.mergeAll();
         notes.write(2, 3, 0);
         due.equal("the entries", Texts.register(notes, 2, 3), "0");
@@ -307,7 +307,7 @@ final class ChangeBoundaries {
     }
 
     private static void tagsAndRegistersShareNumbers(Checks due) {
-        OfflineNotes notes = Worlds.empty(4, 1, 4);
+        Notes notes = Worlds.empty(4, 1, 4);
         notes.write(3, 3, 5);
         due.equal("the first dot", notes.versionEntry(3, 3), 1);
         due.equal("the second dot", notes.addTag(3, 15), 2);
@@ -321,7 +321,7 @@ final class ChangeBoundaries {
 
     private static void replacedFrom0To4(Checks due) {
         for (int entries = 0; entries <= 4; entries++) {
-            OfflineNotes notes = Texts.loaded("replicas 4 0 4;write 0 3 1;write 1 3 1;write 2 3 1;write 3 3 1");
+            Notes notes = Texts.loaded("replicas 4 0 4;write 0 3 1;write 1 3 1;write 2 3 1;write 3 3 1");
             for (int replica = 1; replica < entries; replica++) {
                 notes.merge(0, replica);
             }
@@ -338,7 +338,7 @@ final class ChangeBoundaries {
     // ---- merging
 
     private static void mergeWithItself(Checks due) {
-        OfflineNotes notes = new OfflineNotes();
+        Notes notes = new Notes();
         String before = Views.world(notes);
         for (int replica = 0; replica < 3; replica++) {
             due.no("merge with itself", notes.merge(replica, replica));
@@ -350,7 +350,7 @@ final class ChangeBoundaries {
     private static void changedOrNot(Checks due) {
         String[] changes = {"inc 3 3 1", "dec 3 3 1", "add 3 p", "remove 3 a", "write 3 3 0", "add 3 b;remove 3 b", "add 3 a"};
         for (String change : changes) {
-            OfflineNotes notes = Texts.loaded("replicas 4 4 4;add 0 a;write 0 3 0;merge 3 0;" + change);
+            Notes notes = Texts.loaded("replicas 4 4 4;add 0 a;write 0 3 0;merge 3 0;" + change);
             due.no("a merge of an older state after " + change, notes.merge(3, 0));
             due.yes("a merge of " + change, notes.merge(0, 3));
             due.no("the same merge again", notes.merge(0, 3));
@@ -365,7 +365,7 @@ final class ChangeBoundaries {
 
     private static void allAreEqual(Checks due) {
         for (int count = 1; count <= 4; count++) {
-            OfflineNotes notes = Worlds.busy(count, 4, 4, 2);
+            Notes notes = Worlds.busy(count, 4, 4, 2);
             int tags = notes.mergedTags();
             int value = notes.mergedValue(3);
             int conflicts = notes.mergedConflicts();
@@ -376,14 +376,14 @@ final class ChangeBoundaries {
             due.equal("the conflicts of the last one", notes.conflicts(count - 1), conflicts);
             due.equal("the messages after it", notes.messageCount(), 2);
         }
-        OfflineNotes full = Worlds.full();
+        Notes full = Worlds.full();
         full.mergeAll();
         due.equal("the dots of all", full.liveDots(0, 15) * 10 + full.entryCount(3, 3), 44);
     }
 
     private static void changedFrom0To4(Checks due) {
         for (int count = 1; count <= 4; count++) {
-            OfflineNotes notes = Worlds.empty(count, 1, 1);
+            Notes notes = Worlds.empty(count, 1, 1);
             due.equal("mergeAll of equal ones", notes.mergeAll(), 0);
             for (int changed = 1; changed <= count; changed++) {
                 for (int replica = 0; replica < changed; replica++) {
@@ -393,7 +393,7 @@ final class ChangeBoundaries {
             }
             due.equal("mergeAll again", notes.mergeAll(), 0);
         }
-        OfflineNotes some = Texts.loaded("replicas 4 0 0; add 0 a; merge 1 0; merge 2 0");
+        Notes some = Texts.loaded("replicas 4 0 0; add 0 a; merge 1 0; merge 2 0");
         due.equal("mergeAll with one that lags behind", some.mergeAll(), 1);
     }
 }

@@ -52,7 +52,7 @@ final class ContentBoundaries {
     // ---- tags
 
     private interface TagUse {
-        boolean of(OfflineNotes notes, int tag);
+        boolean of(Notes notes, int tag);
     }
 
     /** The answer is due for every tag if all have been added in their order, and tags 15 and 0 are added alone. */
@@ -61,14 +61,14 @@ final class ContentBoundaries {
         for (char tag = 'a'; tag <= 'p'; tag++) {
             text.append(";add 0 ").append(tag);
         }
-        OfflineNotes notes = Texts.loaded(text.toString());
+        Notes notes = Texts.loaded(text.toString());
         for (int tag = 0; tag <= 15; tag++) {
             due.yes("the answer for tag " + tag, call.of(notes, tag));
         }
         for (int tag : new int[] {Integer.MIN_VALUE, -1, 16, 17, Integer.MAX_VALUE}) {
             due.noIndex("tag " + tag, () -> call.of(notes, tag));
         }
-        OfflineNotes empty = Worlds.empty(1, 0, 0);
+        Notes empty = Worlds.empty(1, 0, 0);
         due.no("the answer for an absent first tag", call.of(empty, 0));
         due.no("the answer for an absent last tag", call.of(empty, 15));
     }
@@ -76,7 +76,7 @@ final class ContentBoundaries {
     private static void sixteenTags(Checks due) {
         for (int tag = 0; tag < 16; tag++) {
             char letter = (char) ('a' + tag);
-            OfflineNotes notes = Texts.loaded("replicas 1 0 4;add 0 " + letter);
+            Notes notes = Texts.loaded("replicas 1 0 4;add 0 " + letter);
             for (int other = 0; other < 16; other++) {
                 due.that("hasTag(0, " + other + ") after add of " + letter, notes.hasTag(0, other) == (other == tag));
             }
@@ -87,7 +87,7 @@ final class ContentBoundaries {
 
     private static void oneDotIsPresent(Checks due) {
         for (int by = 0; by < 4; by++) {
-            OfflineNotes notes = Worlds.empty(4, 0, 0);
+            Notes notes = Worlds.empty(4, 0, 0);
             due.no("hasTag without a dot", notes.hasTag(by, 9));
             notes.addTag(by, 9);
             due.yes("hasTag with a dot of replica " + by, notes.hasTag(by, 9));
@@ -105,7 +105,7 @@ final class ContentBoundaries {
     }
 
     private static void dotsFrom0To4(Checks due) {
-        OfflineNotes notes = Texts.loaded("replicas 4 0 0; add 0 p; add 1 p; add 2 p; add 3 p");
+        Notes notes = Texts.loaded("replicas 4 0 0; add 0 p; add 1 p; add 2 p; add 3 p");
         due.equal("liveDots of none", notes.liveDots(0, 14), 0);
         for (int replica = 1; replica <= 4; replica++) {
             due.equal("liveDots of " + replica, notes.liveDots(0, 15), replica);
@@ -121,7 +121,7 @@ final class ContentBoundaries {
     }
 
     private static void noDotIsZero(Checks due) {
-        OfflineNotes notes = Texts.loaded("replicas 4 0 1; add 3 a; add 3 p; write 3 0 9; merge 0 3; add 0 p");
+        Notes notes = Texts.loaded("replicas 4 0 1; add 3 a; add 3 p; write 3 0 9; merge 0 3; add 0 p");
         due.equal("tagDot of the first dot", notes.tagDot(0, 0, 3), 1);
         due.equal("tagDot of the second dot", notes.tagDot(3, 15, 3), 2);
         due.equal("tagDot of a replaced dot", notes.tagDot(0, 15, 3), 0);
@@ -138,7 +138,7 @@ final class ContentBoundaries {
     }
 
     private static void tagCountsFrom0To16(Checks due) {
-        OfflineNotes notes = Texts.loaded("replicas 2 4 1; write 0 0 3; inc 0 0 1; dec 0 3 1");
+        Notes notes = Texts.loaded("replicas 2 4 1; write 0 0 3; inc 0 0 1; dec 0 3 1");
         due.equal("tagCount of none", notes.tagCount(0), 0);
         for (int tag = 15; tag >= 0; tag--) {
             notes.addTag(0, tag);
@@ -153,13 +153,13 @@ final class ContentBoundaries {
     }
 
     private static void tagsByIndex(Checks due) {
-        OfflineNotes notes = Texts.loaded("replicas 1 0 0; add 0 p; add 0 h; add 0 a");
+        Notes notes = Texts.loaded("replicas 1 0 0; add 0 p; add 0 h; add 0 a");
         due.equal("tagAt 0", notes.tagAt(0, 0), 0);
         due.equal("tagAt 1", notes.tagAt(0, 1), 7);
         due.equal("tagAt 2", notes.tagAt(0, 2), 15);
         notes.removeTag(0, 0);
         due.equal("tagAt 0 after the removal", notes.tagAt(0, 0), 7);
-        OfflineNotes all = Worlds.crowded();
+        Notes all = Worlds.crowded();
         for (int index = 0; index < 16; index++) {
             due.equal("tagAt of all", all.tagAt(3, index), index);
         }
@@ -173,14 +173,14 @@ final class ContentBoundaries {
     }
 
     /** Registers are written and counters used beside the tags, since they must not count. */
-    private static OfflineNotes threeTags() {
+    private static Notes threeTags() {
         return Texts.loaded("replicas 2 4 4; add 0 a; add 0 h; add 0 p; write 0 0 9; write 0 3 9; dec 0 3 1; add 1 c");
     }
 
     // ---- registers
 
     private static void entriesFrom0To4(Checks due) {
-        OfflineNotes notes = Texts.loaded("replicas 4 0 4; write 0 3 0; write 1 3 0; write 2 3 0; write 3 3 0");
+        Notes notes = Texts.loaded("replicas 4 0 4; write 0 3 0; write 1 3 0; write 2 3 0; write 3 3 0");
         due.equal("entryCount of none", notes.entryCount(0, 2), 0);
         for (int replica = 1; replica <= 4; replica++) {
             due.equal("entryCount of " + replica, notes.entryCount(0, 3), replica);
@@ -196,7 +196,7 @@ final class ContentBoundaries {
     }
 
     private static void noEntryIsNone(Checks due) {
-        OfflineNotes notes = Texts.loaded("replicas 4 0 4; write 3 3 0; merge 0 3; write 0 2 99; write 3 0 5");
+        Notes notes = Texts.loaded("replicas 4 0 4; write 3 3 0; merge 0 3; write 0 2 99; write 3 0 5");
         due.equal("entryValue of 0", notes.entryValue(0, 3, 3), 0);
         due.equal("entryValue of 99", notes.entryValue(0, 2, 0), 99);
         due.equal("entryValue by another", notes.entryValue(0, 3, 0), OfflineNotes.NONE);
@@ -215,7 +215,7 @@ final class ContentBoundaries {
 
     private static void greatestOfFour(Checks due) {
         for (int greatest = 0; greatest < 4; greatest++) {
-            OfflineNotes notes = Worlds.empty(4, 0, 4);
+            Notes notes = Worlds.empty(4, 0, 4);
             for (int replica = 0; replica < 4; replica++) {
                 notes.write(replica, 3, replica == greatest ? 99 : 98 - replica);
                 notes.write(replica, 2, 0);
@@ -225,7 +225,7 @@ final class ContentBoundaries {
             due.equal("greatestValue of four zeros", notes.greatestValue(3, 2), 0);
         }
         for (int register = 0; register < 4; register++) {
-            OfflineNotes crowded = Worlds.crowded();
+            Notes crowded = Worlds.crowded();
             crowded.write(1, register, 0);
             due.equal("greatestValue of 0 beside greater ones", crowded.greatestValue(1, register), 0);
             due.equal("greatestValue before the write", crowded.greatestValue(0, register), 30 + register);
@@ -233,7 +233,7 @@ final class ContentBoundaries {
     }
 
     private static void greatestOfNone(Checks due) {
-        OfflineNotes notes = Texts.loaded("replicas 2 0 4; write 1 3 0; write 0 2 7");
+        Notes notes = Texts.loaded("replicas 2 0 4; write 1 3 0; write 0 2 7");
         due.equal("greatestValue of none", notes.greatestValue(0, 3), OfflineNotes.NONE);
         due.equal("greatestValue of a zero", notes.greatestValue(1, 3), 0);
         due.equal("greatestValue of the first register", notes.greatestValue(0, 0), OfflineNotes.NONE);
@@ -245,7 +245,7 @@ final class ContentBoundaries {
     }
 
     private static void twoEntriesAreAConflict(Checks due) {
-        OfflineNotes notes = Texts.loaded("replicas 4 0 4; write 0 3 1; write 3 3 1; write 2 3 1; write 1 3 1");
+        Notes notes = Texts.loaded("replicas 4 0 4; write 0 3 1; write 3 3 1; write 2 3 1; write 1 3 1");
         due.equal("conflicts of no entry", notes.entryCount(0, 0) + notes.conflicts(0), 0);
         due.equal("conflicts of one entry", 10 * notes.entryCount(0, 3) + notes.conflicts(0), 10);
         notes.merge(0, 3);
@@ -258,7 +258,7 @@ final class ContentBoundaries {
     }
 
     private static void conflictsFrom0To4(Checks due) {
-        OfflineNotes notes = Worlds.empty(2, 0, 4);
+        Notes notes = Worlds.empty(2, 0, 4);
         for (int tag = 0; tag < 16; tag++) {
             notes.addTag(0, tag);
             notes.addTag(1, tag);

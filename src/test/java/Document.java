@@ -15,6 +15,7 @@ final class Document {
 
     /** Index 0 holds what stands ahead of the promises. */
     private final List<List<String>> lines = new ArrayList<>();
+    private final List<String> face = new ArrayList<>();
 
     Document(Path file) {
         for (int i = 0; i <= PROMISES; i++) {
@@ -29,6 +30,8 @@ final class Document {
         for (String line : linesOf(file)) {
             if (line.startsWith("```")) {
                 code = !code;
+            } else if (code && line.startsWith("    public ")) {
+                face.add(line.strip());
             } else if (line.startsWith("## Promise ")) {
                 promise = Integer.parseInt(line.substring("## Promise ".length(), line.indexOf(':')));
             } else if (line.startsWith("## Not promised")) {
@@ -39,12 +42,17 @@ final class Document {
         }
     }
 
-    private static List<String> linesOf(Path file) {
+    static List<String> linesOf(Path file) {
         try {
             return Files.readAllLines(file);
         } catch (IOException missing) {
-            throw new IllegalStateException("no document at " + file.toAbsolutePath(), missing);
+            throw new IllegalStateException("nothing to read at " + file.toAbsolutePath(), missing);
         }
+    }
+
+    /** The lines of the class as the document shows it, each with what it declares. */
+    List<String> face() {
+        return face;
     }
 
     boolean tells(int promise, String quoted) {

@@ -3,8 +3,8 @@ import java.lang.reflect.Field;
 import java.lang.reflect.Member;
 import java.lang.reflect.Method;
 import java.lang.reflect.Modifier;
+import java.nio.file.Path;
 import java.util.ArrayList;
-import java.util.Arrays;
 import java.util.HashSet;
 import java.util.List;
 import java.util.Set;
@@ -12,77 +12,28 @@ import java.util.TreeSet;
 
 /** Compares the face of the class with that of the document, to the letter. */
 public final class FaceTests {
-    private static final String[] FACE = {
-        "OfflineNotes()",
-        "int append(int,int,int,int,int) throws IllegalStateException",
-        "int load(int) throws IndexOutOfBoundsException,IllegalArgumentException",
-        "int errorKind()",
-        "int errorOffset()",
-        "int replicaCount()",
-        "int counterCount()",
-        "int registerCount()",
-        "int versionEntry(int,int) throws IndexOutOfBoundsException",
-        "boolean areEqual(int,int) throws IndexOutOfBoundsException",
-        "boolean covers(int,int) throws IndexOutOfBoundsException",
-        "boolean areConcurrent(int,int) throws IndexOutOfBoundsException",
-        "int differentStates()",
-        "int counterValue(int,int) throws IndexOutOfBoundsException",
-        "int increments(int,int,int) throws IndexOutOfBoundsException",
-        "int decrements(int,int,int) throws IndexOutOfBoundsException",
-        "boolean hasTag(int,int) throws IndexOutOfBoundsException",
-        "int liveDots(int,int) throws IndexOutOfBoundsException",
-        "int tagDot(int,int,int) throws IndexOutOfBoundsException",
-        "int tagCount(int) throws IndexOutOfBoundsException",
-        "int tagAt(int,int) throws IndexOutOfBoundsException",
-        "int entryCount(int,int) throws IndexOutOfBoundsException",
-        "int entryValue(int,int,int) throws IndexOutOfBoundsException",
-        "int greatestValue(int,int) throws IndexOutOfBoundsException",
-        "int conflicts(int) throws IndexOutOfBoundsException",
-        "int unseenDots(int,int) throws IndexOutOfBoundsException",
-        "int deltaSize(int,int) throws IndexOutOfBoundsException",
-        "int tagsGained(int,int) throws IndexOutOfBoundsException",
-        "int tagsLost(int,int) throws IndexOutOfBoundsException",
-        "int mergedValue(int) throws IndexOutOfBoundsException",
-        "int mergedTags()",
-        "int mergedConflicts()",
-        "int convergenceErrors()",
-        "double meanTags()",
-        "float completeShare()",
-        "int messageCount()",
-        "int senderOf(int) throws IndexOutOfBoundsException",
-        "boolean isNews(int,int) throws IndexOutOfBoundsException",
-        "int increment(int,int,int) throws IndexOutOfBoundsException,IllegalArgumentException",
-        "int decrement(int,int,int) throws IndexOutOfBoundsException,IllegalArgumentException",
-        "int addTag(int,int) throws IndexOutOfBoundsException",
-        "int removeTag(int,int) throws IndexOutOfBoundsException,IllegalStateException",
-        "int write(int,int,int) throws IndexOutOfBoundsException,IllegalArgumentException",
-        "boolean merge(int,int) throws IndexOutOfBoundsException",
-        "int mergeAll()",
-        "int send(int) throws IndexOutOfBoundsException,IllegalStateException",
-        "boolean deliver(int,int) throws IndexOutOfBoundsException",
-        "int drop(int) throws IndexOutOfBoundsException",
-        "int restore(int) throws IndexOutOfBoundsException,IllegalStateException",
-        "int undo() throws IllegalStateException",
-        "int save(int) throws IndexOutOfBoundsException",
-        "int writeTags(int) throws IndexOutOfBoundsException",
-        "int writeRegister(int,int) throws IndexOutOfBoundsException",
-        "int outputByte(int) throws IndexOutOfBoundsException",
-    };
-
     private static final Checks CHECKS = new Checks("FaceTests");
 
     public static void main(String[] args) {
+        Document document = new Document(Path.of(args.length > 0 ? args[0] : "../shared/DOC.md"));
         CHECKS.equal("NONE", OfflineNotes.NONE, -1);
         CHECKS.equal("the class", Modifier.toString(OfflineNotes.class.getModifiers()), "public final");
         CHECKS.equal("the superclass", OfflineNotes.class.getSuperclass().getName(), "java.lang.Object");
-        facesAreEqual();
+        facesAreEqual(document);
         fieldsAreHidden();
         privateMethodsHaveNamesOfTheirOwn();
         classesInsideAreStatic();
         CHECKS.finish();
     }
 
-    private static void facesAreEqual() {
+    private static void facesAreEqual(Document document) {
+        Set<String> due = new TreeSet<>();
+        for (String line : document.face()) {
+            if (line.contains("(")) {
+                due.add(withoutNames(line));
+            }
+        }
+        CHECKS.equal("the calls of the face", due.size(), Document.PROMISES);
         Set<String> found = new TreeSet<>();
         for (Method method : OfflineNotes.class.getDeclaredMethods()) {
             if (!isHidden(method)) {
@@ -95,7 +46,13 @@ public final class FaceTests {
                 found.add("OfflineNotes" + list(constructor.getParameterTypes(), constructor.getExceptionTypes()));
             }
         }
-        CHECKS.equal("the face", found.toString(), new TreeSet<>(Arrays.asList(FACE)).toString());
+        CHECKS.equal("the face", found.toString(), due.toString());
+    }
+
+    /** A line of the document's face, without "public" and the names of its parameters. */
+    private static String withoutNames(String line) {
+        return line.replace("public ", "").replaceAll("(int|boolean|double|float) \\w+(?=[,)])", "$1").replace(", ", ",")
+                .replace(";", "");
     }
 
     private static boolean isHidden(Member member) {

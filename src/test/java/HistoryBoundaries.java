@@ -5,6 +5,16 @@ import java.util.List;
 final class HistoryBoundaries {
     private static final String WRONG_SLOT = "Throws `IndexOutOfBoundsException` if slot is neither 0 nor 1";
     private static final String SPACES = " ".repeat(20);
+    /** The calls of promises 4 to 38, with arguments that a new object answers. */
+    private static final List<Refusals.Use> QUESTIONS = List.of(Notes::errorKind, Notes::errorOffset, Notes::replicaCount,
+            Notes::counterCount, Notes::registerCount, n -> n.versionEntry(1, 0), n -> n.areEqual(0, 1), n -> n.covers(1, 0),
+            n -> n.areConcurrent(0, 2), Notes::differentStates, n -> n.counterValue(1, 0), n -> n.increments(1, 0, 0),
+            n -> n.decrements(1, 0, 1), n -> n.hasTag(0, 0), n -> n.liveDots(0, 0), n -> n.tagDot(0, 0, 0),
+            n -> n.tagCount(0), n -> n.tagAt(0, 0), n -> n.entryCount(0, 0), n -> n.entryValue(0, 0, 0),
+            n -> n.greatestValue(0, 0), n -> n.conflicts(0), n -> n.unseenDots(0, 1), n -> n.deltaSize(0, 1),
+            n -> n.tagsGained(0, 1), n -> n.tagsLost(0, 1), n -> n.mergedValue(0), Notes::mergedTags, Notes::mergedConflicts,
+            Notes::convergenceErrors, Notes::meanTags, Notes::completeShare, Notes::messageCount, n -> n.senderOf(0),
+            n -> n.isNews(0, 2));
 
     private HistoryBoundaries() {
     }
@@ -36,6 +46,7 @@ final class HistoryBoundaries {
     private static void addUndo(Sentences sentences) {
         sentences.test(50, "The methods in the section \"changes\" record a change whenever they return normally",
                 HistoryBoundaries::eachChangeIsRecorded);
+        sentences.test(50, "The methods in the section \"changes\"", HistoryBoundaries::questionsAlterNothing);
         sentences.test(50, "even if they alter nothing.", HistoryBoundaries::recordedIfNothingIsAltered);
         sentences.test(50, "The last 10 recorded changes can be undone.", HistoryBoundaries::tenAtMost);
         sentences.test(50, "Undoes the last recorded change that has not been undone.", HistoryBoundaries::lastNotUndone);
@@ -57,15 +68,15 @@ final class HistoryBoundaries {
 
     // ---- slots
 
-    private static OfflineNotes bothSaved() {
-        OfflineNotes notes = Worlds.busy();
+    private static Notes bothSaved() {
+        Notes notes = Worlds.busy();
         notes.save(0);
         notes.addTag(1, 9);
         return notes;
     }
 
     private static void restoresBothSlots(Checks due) {
-        OfflineNotes notes = new OfflineNotes();
+        Notes notes = new Notes();
         notes.addTag(0, 8);
         String first = Views.world(notes);
         notes.save(0);
@@ -84,7 +95,7 @@ final class HistoryBoundaries {
 
     private static void staysSaved(Checks due) {
         for (int slot = 0; slot < 2; slot++) {
-            OfflineNotes notes = Worlds.busy();
+            Notes notes = Worlds.busy();
             notes.save(slot);
             String saved = Views.world(notes);
             for (int time = 1; time <= 12; time++) {
@@ -101,7 +112,7 @@ final class HistoryBoundaries {
 
     private static void restoresMessages0To6(Checks due) {
         for (int count = 0; count <= 6; count++) {
-            OfflineNotes notes = Worlds.busy(3, 1, 1, count);
+            Notes notes = Worlds.busy(3, 1, 1, count);
             String messages = Views.messages(Worlds.busy(3, 1, 1, count));
             notes.save(0);
             for (int i = 0; i < 6 - count; i++) {
@@ -119,7 +130,7 @@ final class HistoryBoundaries {
     private static void emptySlotIsRefused(Checks due) {
         Refusals.refused(due, Refusals.BAD_STATE, Worlds::busy, "restore of the empty slot 0", notes -> notes.restore(0));
         Refusals.answered(due, Worlds.busy(), "restore of slot 1", notes -> notes.restore(1));
-        OfflineNotes notes = new OfflineNotes();
+        Notes notes = new Notes();
         due.badState("restore(0) at first", () -> notes.restore(0));
         due.badState("restore(1) at first", () -> notes.restore(1));
         notes.save(0);
@@ -133,26 +144,26 @@ final class HistoryBoundaries {
 
     private static void wrongSlotComesFirst(Checks due) {
         for (int slot : new int[] {Integer.MIN_VALUE, -1, 2, Integer.MAX_VALUE}) {
-            due.noIndex("restore(" + slot + ") with nothing saved", () -> new OfflineNotes().restore(slot));
+            due.noIndex("restore(" + slot + ") with nothing saved", () -> new Notes().restore(slot));
         }
-        due.badState("restore(1) with nothing saved", () -> new OfflineNotes().restore(1));
+        due.badState("restore(1) with nothing saved", () -> new Notes().restore(1));
     }
 
     private static void savesInBothSlots(Checks due) {
         for (int slot = 0; slot < 2; slot++) {
-            OfflineNotes notes = new OfflineNotes();
+            Notes notes = new Notes();
             int other = 1 - slot;
             due.equal("save", notes.save(slot), 1);
             due.badState("the other slot", () -> notes.restore(other));
             due.equal("restore of it", notes.restore(slot), 1);
         }
-        due.noIndex("slot -1", () -> new OfflineNotes().save(-1));
-        due.noIndex("slot 2", () -> new OfflineNotes().save(2));
+        due.noIndex("slot -1", () -> new Notes().save(-1));
+        due.noIndex("slot 2", () -> new Notes().save(2));
     }
 
     private static void replacesWhatWasSaved(Checks due) {
         for (int slot = 0; slot < 2; slot++) {
-            OfflineNotes notes = bothSaved();
+            Notes notes = bothSaved();
             int other = 1 - slot;
             notes.restore(other);
             String kept = Views.world(notes);
@@ -169,7 +180,7 @@ final class HistoryBoundaries {
     }
 
     private static void saveIsNoChange(Checks due) {
-        OfflineNotes notes = new OfflineNotes();
+        Notes notes = new Notes();
         notes.save(0);
         due.badState("undo after save alone", notes::undo);
         notes.addTag(0, 5);
@@ -177,7 +188,7 @@ final class HistoryBoundaries {
         notes.save(1);
         due.equal("undo after a change and two saves", notes.undo(), 0);
         due.no("the change that is undone", notes.hasTag(0, 5));
-        OfflineNotes full = Worlds.busy();
+        Notes full = Worlds.busy();
         full.save(1);
         due.equal("undo after ten changes and a save", full.undo(), 9);
     }
@@ -195,13 +206,13 @@ final class HistoryBoundaries {
     private static List<Refusals.Use> changes() {
         return List.of(notes -> notes.increment(0, 0, 1), notes -> notes.decrement(2, 1, 99), notes -> notes.addTag(0, 0),
                 notes -> notes.removeTag(1, 1), notes -> notes.write(0, 0, 0), notes -> notes.merge(2, 1),
-                OfflineNotes::mergeAll, notes -> notes.send(1), notes -> notes.deliver(0, 2), notes -> notes.drop(0),
+                Notes::mergeAll, notes -> notes.send(1), notes -> notes.deliver(0, 2), notes -> notes.drop(0),
                 notes -> notes.restore(0));
     }
 
     /** A new object whose saved state is another one. */
-    private static OfflineNotes savedBefore() {
-        OfflineNotes notes = new OfflineNotes();
+    private static Notes savedBefore() {
+        Notes notes = new Notes();
         notes.send(2);
         notes.addTag(2, 9);
         notes.save(0);
@@ -212,42 +223,33 @@ final class HistoryBoundaries {
 
     private static void eachChangeIsRecorded(Checks due) {
         for (int i = 0; i < changes().size(); i++) {
-            OfflineNotes notes = savedBefore();
+            Notes notes = savedBefore();
             due.badState("undo ahead of change " + i, notes::undo);
             changes().get(i).of(notes);
             due.equal("undo of change " + i, notes.undo(), 0);
             due.badState("undo once more after change " + i, notes::undo);
         }
-        OfflineNotes asked = Worlds.full();
-        askAll(asked);
-        due.equal("undo after questions", asked.undo(), 9);
-        OfflineNotes fresh = new OfflineNotes();
-        askAll(fresh);
-        due.badState("undo after questions alone", fresh::undo);
+        List<Refusals.Use> others = new ArrayList<>(QUESTIONS);
+        others.addAll(List.of(notes -> notes.append(0, 0, 0, 0, 0), notes -> notes.writeTags(0),
+                notes -> notes.writeRegister(0, 0), notes -> notes.save(1)));
+        for (int i = 0; i < others.size(); i++) {
+            Notes fresh = new Notes();
+            Refusals.answered(due, fresh, "call " + i + " that is no change", others.get(i));
+            due.badState("undo after call " + i + " that is no change", fresh::undo);
+        }
     }
 
-    private static void askAll(OfflineNotes notes) {
-        Views.world(notes);
-        notes.append(0, 0, 0, 0, 0);
-        notes.differentStates();
-        notes.areConcurrent(0, 1);
-        notes.tagsGained(0, 1);
-        notes.tagsLost(0, 1);
-        notes.mergedValue(0);
-        notes.mergedTags();
-        notes.mergedConflicts();
-        notes.convergenceErrors();
-        notes.completeShare();
-        notes.writeTags(0);
-        notes.writeRegister(0, 0);
-        notes.save(1);
+    private static void questionsAlterNothing(Checks due) {
+        for (Refusals.Use question : QUESTIONS) {
+            Refusals.unchanged(due, Worlds::busy, question);
+        }
     }
 
     private static void recordedIfNothingIsAltered(Checks due) {
-        OfflineNotes notes = Texts.loaded("replicas 2 1 1; add 0 a; merge 1 0; send 0");
+        Notes notes = Texts.loaded("replicas 2 1 1; add 0 a; merge 1 0; send 0");
         notes.save(0);
         String before = Views.world(notes);
-        List<Refusals.Use> idle = List.of(n -> n.merge(0, 1), n -> n.merge(1, 1), OfflineNotes::mergeAll, n -> n.deliver(0, 1),
+        List<Refusals.Use> idle = List.of(n -> n.merge(0, 1), n -> n.merge(1, 1), Notes::mergeAll, n -> n.deliver(0, 1),
                 n -> n.deliver(0, 0), n -> n.restore(0));
         for (int i = 0; i < idle.size(); i++) {
             idle.get(i).of(notes);
@@ -261,7 +263,7 @@ final class HistoryBoundaries {
 
     private static void tenAtMost(Checks due) {
         for (int count = 0; count <= 33; count++) {
-            OfflineNotes notes = new OfflineNotes();
+            Notes notes = new Notes();
             List<String> worlds = new ArrayList<>();
             for (int change = 0; change < count; change++) {
                 worlds.add(Views.world(notes));
@@ -278,7 +280,7 @@ final class HistoryBoundaries {
 
     private static void lastNotUndone(Checks due) {
         for (int undone = 0; undone <= 10; undone++) {
-            OfflineNotes notes = new OfflineNotes();
+            Notes notes = new Notes();
             List<String> worlds = new ArrayList<>();
             for (int change = 0; change < 10; change++) {
                 worlds.add(Views.world(notes));
@@ -300,7 +302,7 @@ final class HistoryBoundaries {
     }
 
     private static void leftFrom9To0(Checks due) {
-        OfflineNotes notes = Worlds.busy();
+        Notes notes = Worlds.busy();
         for (int left = 9; left >= 0; left--) {
             due.equal("undo", notes.undo(), left);
         }
@@ -315,15 +317,15 @@ final class HistoryBoundaries {
     }
 
     private static void nothingToUndoIsRefused(Checks due) {
-        Refusals.refused(due, Refusals.BAD_STATE, OfflineNotes::new, "undo at first", OfflineNotes::undo);
-        Refusals.refused(due, Refusals.BAD_STATE, HistoryBoundaries::allUndone, "undo after ten", OfflineNotes::undo);
+        Refusals.refused(due, Refusals.BAD_STATE, Notes::new, "undo at first", Notes::undo);
+        Refusals.refused(due, Refusals.BAD_STATE, HistoryBoundaries::allUndone, "undo after ten", Notes::undo);
         Refusals.refused(due, Refusals.BAD_STATE, () -> Texts.loaded("replicas 2 1 1;add 0 a;send 0"), "undo after load",
-                OfflineNotes::undo);
-        Refusals.answered(due, Worlds.busy(), "undo of the first of ten", OfflineNotes::undo);
+                Notes::undo);
+        Refusals.answered(due, Worlds.busy(), "undo of the first of ten", Notes::undo);
     }
 
-    private static OfflineNotes allUndone() {
-        OfflineNotes notes = Worlds.busy();
+    private static Notes allUndone() {
+        Notes notes = Worlds.busy();
         for (int i = 0; i < 10; i++) {
             notes.undo();
         }
@@ -332,7 +334,7 @@ final class HistoryBoundaries {
 
     /** All refusals in a row, on one object: a bit that each of them changed would add up. */
     private static void refusedCallsAlterNothing(Checks due) {
-        OfflineNotes notes = Worlds.busy(3, 2, 2, 6);
+        Notes notes = Worlds.busy(3, 2, 2, 6);
         notes.removeTag(0, 3);
         for (int wrong : new int[] {Integer.MIN_VALUE, -1, 16, Integer.MAX_VALUE}) {
             refuseIndices(due, notes, wrong);
@@ -343,12 +345,12 @@ final class HistoryBoundaries {
         due.badState("removeTag", () -> notes.removeTag(0, 3));
         due.badState("send", () -> notes.send(0));
         due.badState("restore", () -> notes.restore(0));
-        OfflineNotes untouched = Worlds.busy(3, 2, 2, 6);
+        Notes untouched = Worlds.busy(3, 2, 2, 6);
         untouched.removeTag(0, 3);
         due.equal("all after refusals", Views.everything(notes), Views.everything(untouched));
     }
 
-    private static void refuseIndices(Checks due, OfflineNotes notes, int wrong) {
+    private static void refuseIndices(Checks due, Notes notes, int wrong) {
         List<Refusals.Use> calls = List.of(n -> n.increment(wrong, 0, 1), n -> n.decrement(0, wrong, 1), n -> n.addTag(0, wrong),
                 n -> n.removeTag(0, wrong), n -> n.write(0, wrong, 1), n -> n.merge(0, wrong), n -> n.merge(wrong, 0),
                 n -> n.send(wrong), n -> n.deliver(wrong, 0), n -> n.deliver(0, wrong), n -> n.drop(wrong));
@@ -370,14 +372,14 @@ final class HistoryBoundaries {
         String before = Views.world(savedBefore());
         String messages = Views.messages(savedBefore());
         for (int i = 0; i < changes().size(); i++) {
-            OfflineNotes notes = savedBefore();
+            Notes notes = savedBefore();
             changes().get(i).of(notes);
             due.no("change " + i + " alters nothing", Views.world(notes).equals(before));
             notes.undo();
             due.equal("all after undo of change " + i, Views.world(notes), before);
             due.equal("the messages after undo of change " + i, Views.messages(notes), messages);
         }
-        OfflineNotes all = savedBefore();
+        Notes all = savedBefore();
         for (Refusals.Use change : List.of(changes().get(2), changes().get(8), changes().get(9), changes().get(6))) {
             change.of(all);
         }
@@ -385,7 +387,7 @@ final class HistoryBoundaries {
             all.undo();
         }
         due.equal("all after undo of four changes", Views.world(all), before);
-        OfflineNotes six = Worlds.busy(3, 1, 1, 6);
+        Notes six = Worlds.busy(3, 1, 1, 6);
         String full = Views.messages(Worlds.busy(3, 1, 1, 6));
         six.drop(0);
         six.send(2);
@@ -397,7 +399,7 @@ final class HistoryBoundaries {
     }
 
     private static void undoLeavesTheInput(Checks due) {
-        OfflineNotes notes = new OfflineNotes();
+        Notes notes = new Notes();
         notes.addTag(0, 5);
         Texts.append(notes, Texts.bytes("replicas 2 1 1;add 0"));
         notes.addTag(0, 6);
@@ -410,7 +412,7 @@ final class HistoryBoundaries {
     }
 
     private static void undoLeavesTheOutput(Checks due) {
-        OfflineNotes notes = new OfflineNotes();
+        Notes notes = new Notes();
         notes.addTag(0, 15);
         notes.writeTags(0);
         notes.undo();
@@ -422,19 +424,19 @@ final class HistoryBoundaries {
     }
 
     private static void undoLeavesTheError(Checks due) {
-        OfflineNotes notes = new OfflineNotes();
+        Notes notes = new Notes();
         notes.addTag(0, 15);
         due.equal("an error", Texts.error(notes, "replicas 2 1 9"), "2@13");
         due.equal("undo after an error", notes.undo(), 0);
         due.equal("the error after undo", Views.error(notes), "2@13");
-        OfflineNotes none = Texts.loaded("replicas 2 1 1");
+        Notes none = Texts.loaded("replicas 2 1 1");
         none.addTag(0, 15);
         none.undo();
         due.equal("no error after undo", Views.error(none), "0@-1");
     }
 
     private static void undoLeavesSavedStates(Checks due) {
-        OfflineNotes notes = new OfflineNotes();
+        Notes notes = new Notes();
         notes.addTag(0, 15);
         notes.send(0);
         notes.save(0);

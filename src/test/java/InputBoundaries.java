@@ -61,23 +61,22 @@ final class InputBoundaries {
     private static void newObjectIsAsTheText(Checks due) {
         String text = "replicas 3 2 1; inc 0 0 5; dec 1 0 2; add 0 a; add 1 b; send 0; merge 1 0; remove 1 a; add 0 a;"
                 + " write 0 0 7; write 2 0 9; add 2 c";
-        due.equal("a new object", Views.everything(new OfflineNotes()), Views.everything(Texts.loaded(text)));
-        due.equal("its messages", Views.messages(new OfflineNotes()), Views.messages(Texts.loaded(text)));
-        due.equal("its first replica", Views.state(new OfflineNotes(), 0),
+        due.equal("a new object", Views.everything(new Notes()), Views.everything(Texts.loaded(text)));
+        due.equal("its first replica", Views.state(new Notes(), 0),
                 "3 +5-0 +0-0 a2 =7 ; 0 +0-0 +0-0 =-1 ; 0 +0-0 +0-0 =-1 ; ");
     }
 
     private static void newBuffersAreEmpty(Checks due) {
-        due.noIndex("outputByte(0) at first", () -> new OfflineNotes().outputByte(0));
-        due.noIndex("load(1) at first", () -> new OfflineNotes().load(1));
-        due.badArgument("load(0) at first", () -> new OfflineNotes().load(0));
-        due.equal("append at first", new OfflineNotes().append(0, 0, 0, 0, 0), 20);
+        due.noIndex("outputByte(0) at first", () -> new Notes().outputByte(0));
+        due.noIndex("load(1) at first", () -> new Notes().load(1));
+        due.badArgument("load(0) at first", () -> new Notes().load(0));
+        due.equal("append at first", new Notes().append(0, 0, 0, 0, 0), 20);
     }
 
     private static void callsUpTo512(Checks due) {
-        OfflineNotes adding = new OfflineNotes();
-        OfflineNotes counting = new OfflineNotes();
-        OfflineNotes merging = new OfflineNotes();
+        Notes adding = new Notes();
+        Notes counting = new Notes();
+        Notes merging = new Notes();
         for (int call = 1; call <= 512; call++) {
             due.equal("addTag, call " + call, adding.addTag(0, call % 16), 3 + call);
             due.equal("increment, call " + call, counting.increment(0, 0, 99), 5 + 99 * call);
@@ -88,13 +87,13 @@ final class InputBoundaries {
 
     // ---- promise 2
 
-    private static int append(OfflineNotes notes) {
+    private static int append(Notes notes) {
         return notes.append(Texts.SPACES, Texts.SPACES, Texts.SPACES, Texts.SPACES, Texts.SPACES);
     }
 
     private static void appendAdds20Bytes(Checks due) {
         for (int rows = 1; rows <= 30; rows++) {
-            OfflineNotes notes = new OfflineNotes();
+            Notes notes = new Notes();
             for (int i = 0; i < rows; i++) {
                 append(notes);
             }
@@ -110,13 +109,13 @@ final class InputBoundaries {
             for (int at = 0; at < 20; at++) {
                 byte[] row = Texts.bytes(" ".repeat(20));
                 row[at] = (byte) sign;
-                OfflineNotes notes = new OfflineNotes();
+                Notes notes = new Notes();
                 Texts.append(notes, row);
                 due.badArgument("load with byte " + sign, () -> notes.load(20));
                 due.equal("the place of byte " + sign, Views.error(notes), "1@" + at);
             }
         }
-        OfflineNotes order = new OfflineNotes();
+        Notes order = new Notes();
         // "repl" "icas" " 4 3" " 2;i" "nc 3"
         order.append(0x7265706c, 0x69636173, 0x20342033, 0x20323b69, 0x6e632033);
         // " 2 1" "7;ad" "d 2 " "p;ad" "d 1b"
@@ -127,7 +126,7 @@ final class InputBoundaries {
     }
 
     private static void appendCountsFrom20To600(Checks due) {
-        OfflineNotes notes = new OfflineNotes();
+        Notes notes = new Notes();
         for (int call = 1; call <= 30; call++) {
             due.equal("append, call " + call, append(notes), 20 * call);
         }
@@ -137,8 +136,8 @@ final class InputBoundaries {
     }
 
     /** A busy object with a text that is followed by rows of spaces. */
-    private static OfflineNotes withRows(int rows) {
-        OfflineNotes notes = Worlds.busyWithoutInput(3, 2, 2, 3);
+    private static Notes withRows(int rows) {
+        Notes notes = Worlds.busyWithoutInput(3, 2, 2, 3);
         Texts.append(notes, Texts.bytes("replicas 2 1 1;add 1 p; write 0 0 5     "));
         for (int row = 2; row < rows; row++) {
             append(notes);
@@ -150,11 +149,11 @@ final class InputBoundaries {
         due.equal("append to 580 bytes", append(withRows(29)), 600);
         Refusals.refused(due, Refusals.BAD_STATE, () -> withRows(30), "append to 600 bytes",
                 notes -> notes.append(MIN, -1, 0, 1, MAX));
-        OfflineNotes full = withRows(30);
+        Notes full = withRows(30);
         due.badState("append to 600 bytes", () -> append(full));
         due.equal("load of 600 bytes", full.load(600), 2);
         due.equal("the tags of 600 bytes", Texts.tags(full, 1), "p");
-        OfflineNotes last = new OfflineNotes();
+        Notes last = new Notes();
         Texts.append(last, Texts.bytes("replicas 2 1 1" + " ".repeat(577) + ";add 1 n "));
         due.equal("load of a line at the end of 600 bytes", last.load(600), 2);
         due.equal("the tags of that line", Texts.tags(last, 1), "n");
@@ -163,25 +162,25 @@ final class InputBoundaries {
     // ---- promise 3
 
     private static void loadEndsAtLength(Checks due) {
-        OfflineNotes number = new OfflineNotes();
+        Notes number = new Notes();
         Texts.append(number, Texts.bytes("replicas 2 1 1; inc 0 0 12"));
         due.equal("load up to the middle of a number", number.load(25), 2);
         due.equal("the shorter number", number.counterValue(0, 0), 1);
-        OfflineNotes word = new OfflineNotes();
+        Notes word = new Notes();
         Texts.append(word, Texts.bytes("replicas 2 1 1; add 0 ab"));
         due.equal("load up to the middle of a word", word.load(23), 2);
         due.equal("the shorter word", Texts.tags(word, 0), "a");
-        OfflineNotes wrong = new OfflineNotes();
+        Notes wrong = new Notes();
         Texts.append(wrong, Texts.bytes("replicas 2 1 1 !"));
         due.equal("load up to a wrong byte", wrong.load(15), 2);
-        OfflineNotes cut = new OfflineNotes();
+        Notes cut = new Notes();
         Texts.append(cut, Texts.bytes("replicas 2 1 1"));
         due.badArgument("load of a part that is too short", () -> cut.load(13));
         due.equal("the end of the part", Views.error(cut), "1@13");
     }
 
     private static void loadReplacesAll(Checks due) {
-        OfflineNotes notes = Worlds.busyWithoutInput(4, 4, 4, 6);
+        Notes notes = Worlds.busyWithoutInput(4, 4, 4, 6);
         due.equal("load after all has been used", Texts.load(notes, "replicas 1 0 0"), 1);
         due.equal("the least world", Views.world(notes), "100\n0 ; \n");
         due.equal("load of the greatest world", Texts.load(notes, "replicas 4 4 4"), 4);
@@ -193,7 +192,7 @@ final class InputBoundaries {
     }
 
     private static void loadDiscardsChanges(Checks due) {
-        OfflineNotes notes = Worlds.busyWithoutInput(3, 2, 2, 3);
+        Notes notes = Worlds.busyWithoutInput(3, 2, 2, 3);
         Texts.load(notes, "replicas 3 2 2; add 0 a; send 0");
         due.badState("undo after load", notes::undo);
         notes.addTag(0, 1);
@@ -203,7 +202,7 @@ final class InputBoundaries {
     }
 
     private static void loadDiscardsSavedStates(Checks due) {
-        OfflineNotes notes = Worlds.busyWithoutInput(3, 2, 2, 3);
+        Notes notes = Worlds.busyWithoutInput(3, 2, 2, 3);
         notes.save(0);
         notes.save(1);
         Texts.load(notes, "replicas 3 2 2; add 0 a; send 0");
@@ -216,11 +215,11 @@ final class InputBoundaries {
     }
 
     private static void loadLeavesTheOutput(Checks due) {
-        OfflineNotes notes = Worlds.full();
+        Notes notes = Worlds.full();
         due.equal("an empty output", Views.output(notes), "");
         Texts.load(notes, "replicas 4 4 4; add 0 b");
         due.equal("an empty output after load", Views.output(notes), "");
-        OfflineNotes all = Worlds.full();
+        Notes all = Worlds.full();
         all.mergeAll();
         all.writeTags(0);
         Texts.load(all, "replicas 1 0 0");
@@ -231,7 +230,7 @@ final class InputBoundaries {
 
     private static void loadEmptiesTheInput(Checks due) {
         for (int length : new int[] {22, 599, 600}) {
-            OfflineNotes notes = withRows(30);
+            Notes notes = withRows(30);
             due.equal("load of " + length + " of 600 bytes", notes.load(length), 2);
             due.noIndex("load(1) after load", () -> notes.load(1));
             due.equal("append after load", append(notes), 20);
@@ -240,7 +239,7 @@ final class InputBoundaries {
     }
 
     private static void errorEmptiesTheInput(Checks due) {
-        OfflineNotes notes = withRows(30);
+        Notes notes = withRows(30);
         due.badArgument("load of a part that is too short", () -> notes.load(10));
         due.noIndex("load(1) after an error", () -> notes.load(1));
         due.equal("append after an error", append(notes), 20);
@@ -250,27 +249,27 @@ final class InputBoundaries {
 
     private static void loadOfEachLength(Checks due) {
         for (int length = 0; length <= 40; length++) {
-            OfflineNotes notes = new OfflineNotes();
+            Notes notes = new Notes();
             append(notes);
             append(notes);
             int first = length;
             due.badArgument("load(" + length + ") of 40 spaces", () -> notes.load(first));
             due.equal("the end of them", Views.error(notes), "1@" + length);
         }
-        due.badArgument("load(0) of an empty buffer", () -> new OfflineNotes().load(0));
+        due.badArgument("load(0) of an empty buffer", () -> new Notes().load(0));
         due.equal("load(600) of a full buffer", withRows(30).load(600), 2);
         due.equal("load(599) of a full buffer", withRows(30).load(599), 2);
     }
 
     private static void loadAnswersReplicas(Checks due) {
         for (int replicas = 1; replicas <= 4; replicas++) {
-            due.equal("load", Texts.load(new OfflineNotes(), "replicas " + replicas + " 3 2"), replicas);
+            due.equal("load", Texts.load(new Notes(), "replicas " + replicas + " 3 2"), replicas);
         }
     }
 
     private static void loadBeyondTheInput(Checks due) {
         for (int length : new int[] {MIN, -1, 1, 20, 600, 601, MAX}) {
-            due.noIndex("load(" + length + ") of nothing", () -> new OfflineNotes().load(length));
+            due.noIndex("load(" + length + ") of nothing", () -> new Notes().load(length));
         }
         for (int length : new int[] {MIN, -1, 41, 600, 601, MAX}) {
             due.noIndex("load(" + length + ") of 40 bytes", () -> withRows(2).load(length));
@@ -287,14 +286,14 @@ final class InputBoundaries {
         }
         Refusals.refused(due, Refusals.NO_INDEX, InputBoundaries::threeRows, "load(61) of 60 bytes",
                 notes -> notes.load(61));
-        Refusals.refused(due, Refusals.NO_INDEX, OfflineNotes::new, "load(1) of nothing", notes -> notes.load(1));
-        OfflineNotes notes = threeRows();
+        Refusals.refused(due, Refusals.NO_INDEX, Notes::new, "load(1) of nothing", notes -> notes.load(1));
+        Notes notes = threeRows();
         due.noIndex("load(-1)", () -> notes.load(-1));
         due.equal("the error after it", Views.error(notes), "2@11");
         due.equal("the whole input after it", notes.load(60), 2);
     }
 
-    private static OfflineNotes threeRows() {
+    private static Notes threeRows() {
         return withRows(3);
     }
 
@@ -302,10 +301,10 @@ final class InputBoundaries {
         String six = "replicas 2 0 0;send 0;send 0;send 0;send 0;send 0;send 0";
         String[] texts = {"", "replicas 2 0", "replicas 0 0 0", "replicas 2 0 0;remove 0 a", six + ";send 0"};
         for (String text : texts) {
-            due.badArgument("load of \"" + text + "\"", () -> Texts.load(new OfflineNotes(), text));
+            due.badArgument("load of \"" + text + "\"", () -> Texts.load(new Notes(), text));
         }
-        due.equal("load of six messages", Texts.load(new OfflineNotes(), six), 2);
-        due.equal("load of a present tag", Texts.load(new OfflineNotes(), "replicas 2 0 0;add 0 a;remove 0 a"), 2);
+        due.equal("load of six messages", Texts.load(new Notes(), six), 2);
+        due.equal("load of a present tag", Texts.load(new Notes(), "replicas 2 0 0;add 0 a;remove 0 a"), 2);
     }
 
     private static void errorChangesNothingElse(Checks due) {
@@ -313,21 +312,15 @@ final class InputBoundaries {
         String[] texts = {"", "replicas", "replicas 1 1 x", "replicas 1 1 5", late + "send 0", late + "remove 0 b",
             late + "add 4 a", late + "merge 0 1;deliver 5 0;?"};
         String before = Views.allButInput(Worlds.busyWithoutInput(3, 2, 2, 3));
-        String messages = Views.messages(Worlds.busyWithoutInput(3, 2, 2, 3));
         for (String text : texts) {
-            due.equal("all after \"" + text + "\"", Views.allButInput(afterError(due, text)), before);
-            due.equal("the messages after \"" + text + "\"", Views.messages(afterError(due, text)), messages);
+            Notes notes = Worlds.busyWithoutInput(3, 2, 2, 3);
+            due.badArgument("load of \"" + text + "\"", () -> Texts.load(notes, text));
+            due.equal("all after \"" + text + "\"", Views.allButInput(notes), before);
         }
     }
 
-    private static OfflineNotes afterError(Checks due, String text) {
-        OfflineNotes notes = Worlds.busyWithoutInput(3, 2, 2, 3);
-        due.badArgument("load of \"" + text + "\"", () -> Texts.load(notes, text));
-        return notes;
-    }
-
     private static void wrongLengthComesFirst(Checks due) {
-        OfflineNotes notes = new OfflineNotes();
+        Notes notes = new Notes();
         notes.append(0, 0, 0, 0, 0);
         due.noIndex("load(21) of an error", () -> notes.load(21));
         due.noIndex("load(-1) of an error", () -> notes.load(-1));

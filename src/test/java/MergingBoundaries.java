@@ -52,24 +52,24 @@ final class MergingBoundaries {
         addQuestion(sentences, 28, notes -> notes.tagsGained(0, 1));
         addQuestion(sentences, 29, notes -> notes.tagsLost(0, 1));
         addQuestion(sentences, 30, notes -> notes.mergedValue(0));
-        addQuestion(sentences, 31, OfflineNotes::mergedTags);
-        addQuestion(sentences, 32, OfflineNotes::mergedConflicts);
-        addQuestion(sentences, 33, OfflineNotes::convergenceErrors);
-        addQuestion(sentences, 34, OfflineNotes::meanTags);
-        addQuestion(sentences, 35, OfflineNotes::completeShare);
+        addQuestion(sentences, 31, Notes::mergedTags);
+        addQuestion(sentences, 32, Notes::mergedConflicts);
+        addQuestion(sentences, 33, Notes::convergenceErrors);
+        addQuestion(sentences, 34, Notes::meanTags);
+        addQuestion(sentences, 35, Notes::completeShare);
     }
 
     private static void addQuestion(Sentences sentences, int promise, Refusals.Use question) {
         sentences.test(promise, "---- merging: nothing changes.", due -> {
             Refusals.unchanged(due, Worlds::busy, question);
-            Refusals.unchanged(due, OfflineNotes::new, question);
+            Refusals.unchanged(due, Notes::new, question);
             Refusals.unchanged(due, MergingBoundaries::fourConcurrent, question);
         });
     }
 
     /** Each of four replicas knows something that no other one knows, and lacks what a message and the slots have. */
-    private static OfflineNotes fourConcurrent() {
-        OfflineNotes notes = Worlds.crowded();
+    private static Notes fourConcurrent() {
+        Notes notes = Worlds.crowded();
         notes.send(1);
         notes.save(0);
         for (int replica = 0; replica < 4; replica++) {
@@ -98,7 +98,7 @@ final class MergingBoundaries {
     // ---- deltas
 
     private static void dotsThatAreNotLive(Checks due) {
-        OfflineNotes notes = Texts.loaded("replicas 4 1 1; add 3 a; remove 3 a; write 3 0 1; write 3 0 2; inc 3 0 9; merge 0 3;"
+        Notes notes = Texts.loaded("replicas 4 1 1; add 3 a; remove 3 a; write 3 0 1; write 3 0 2; inc 3 0 9; merge 0 3;"
                 + " add 3 b; add 2 c");
         due.equal("unseenDots that are live or not", notes.unseenDots(3, 1), 4);
         due.equal("unseenDots but for the seen ones", notes.unseenDots(3, 0), 1);
@@ -111,7 +111,7 @@ final class MergingBoundaries {
         due.equal("unseenDots of the first one", notes.unseenDots(0, 3), 1);
         notes.mergeAll();
         due.equal("unseenDots after all is merged", notes.unseenDots(0, 1) + notes.unseenDots(1, 0), 0);
-        OfflineNotes full = Worlds.full();
+        Notes full = Worlds.full();
         full.increment(0, 0, 99);
         for (int replica = 0; replica < 4; replica++) {
             due.equal("unseenDots of replica " + replica, full.unseenDots(replica, (replica + 1) % 4), 20);
@@ -124,20 +124,20 @@ final class MergingBoundaries {
     }
 
     private static void equalNumberIsSeen(Checks due) {
-        OfflineNotes tag = Texts.loaded("replicas 2 0 0; add 0 a; merge 1 0; remove 1 a");
+        Notes tag = Texts.loaded("replicas 2 0 0; add 0 a; merge 1 0; remove 1 a");
         due.equal("the delta of a dot whose number is the entry", tag.deltaSize(0, 1), 0);
-        OfflineNotes next = Texts.loaded("replicas 2 0 0; add 0 a; merge 1 0; remove 1 a; add 0 b");
+        Notes next = Texts.loaded("replicas 2 0 0; add 0 a; merge 1 0; remove 1 a; add 0 b");
         due.equal("the delta of a dot whose number is 1 greater", next.deltaSize(0, 1), 2);
         next.merge(0, 1);
         due.equal("the tags after a merge with who has seen one", Texts.tags(next, 0), "b");
-        OfflineNotes entry = Texts.loaded("replicas 2 0 1; write 0 0 7; merge 1 0; write 1 0 8");
+        Notes entry = Texts.loaded("replicas 2 0 1; write 0 0 7; merge 1 0; write 1 0 8");
         due.equal("the delta of an entry whose number is seen", entry.deltaSize(0, 1), 0);
         entry.merge(0, 1);
         due.equal("the entries after a merge with who has seen one", Texts.register(entry, 0, 0), "8");
     }
 
     private static void greaterByOneCounts(Checks due) {
-        OfflineNotes sums = Texts.loaded("replicas 4 4 0; inc 3 3 1; dec 3 0 1; merge 0 3");
+        Notes sums = Texts.loaded("replicas 4 4 0; inc 3 3 1; dec 3 0 1; merge 0 3");
         due.equal("the delta of equal sums", sums.deltaSize(3, 0), 0);
         sums.increment(3, 3, 1);
         due.equal("the delta of a greater increment", sums.deltaSize(3, 0), 1);
@@ -145,14 +145,14 @@ final class MergingBoundaries {
         sums.decrement(3, 0, 1);
         due.equal("the delta of a greater decrement too", sums.deltaSize(3, 0), 2);
         due.equal("the delta to who knows nothing", sums.deltaSize(3, 1), 2);
-        OfflineNotes version = Texts.loaded("replicas 4 0 0; add 3 a; remove 3 a; add 0 a; remove 0 a");
+        Notes version = Texts.loaded("replicas 4 0 0; add 3 a; remove 3 a; add 0 a; remove 0 a");
         due.equal("the delta of an entry alone", version.deltaSize(3, 1), 1);
         due.equal("the delta of an entry that is smaller here", version.deltaSize(0, 3), 1);
         version.merge(1, 3);
         due.equal("the delta of an equal entry", version.deltaSize(3, 1), 0);
         version.merge(1, 0);
         due.equal("the delta of two entries", version.deltaSize(1, 2), 2);
-        OfflineNotes all = Worlds.full();
+        Notes all = Worlds.full();
         for (int i = 0; i < 16; i++) {
             all.increment(i / 4, i % 4, 1);
             all.decrement(i / 4, i % 4, 1);
@@ -167,7 +167,7 @@ final class MergingBoundaries {
     }
 
     private static void unseenLiveDotsCount(Checks due) {
-        OfflineNotes notes = Texts.loaded("replicas 4 0 4; add 3 a; add 3 p; write 3 0 1; write 3 3 2");
+        Notes notes = Texts.loaded("replicas 4 0 4; add 3 a; add 3 p; write 3 0 1; write 3 3 2");
         due.equal("the delta of four live dots", notes.deltaSize(3, 0), 1 + 4);
         notes.removeTag(3, 0);
         due.equal("the delta after a removal", notes.deltaSize(3, 0), 1 + 3);
@@ -191,7 +191,7 @@ final class MergingBoundaries {
     // ---- looks ahead
 
     private static void gainedFrom0To16(Checks due) {
-        OfflineNotes notes = Worlds.empty(3, 4, 1);
+        Notes notes = Worlds.empty(3, 4, 1);
         notes.write(0, 0, 1);
         notes.decrement(0, 3, 1);
         for (int tag = 15; tag >= 0; tag--) {
@@ -216,7 +216,7 @@ final class MergingBoundaries {
     }
 
     private static void lostFrom0To16(Checks due) {
-        OfflineNotes notes = Worlds.full();
+        Notes notes = Worlds.full();
         notes.merge(1, 0);
         for (int tag = 0; tag < 16; tag++) {
             due.equal("tagsLost", notes.tagsLost(0, 1), tag);
@@ -240,7 +240,7 @@ final class MergingBoundaries {
 
     private static void mergedValues(Checks due) {
         due.equal("mergedValue of none", Worlds.empty(4, 4, 4).mergedValue(3), 0);
-        OfflineNotes notes = Texts.loaded("replicas 4 4 0; inc 0 0 1; dec 3 0 2; inc 0 3 99; merge 1 0; inc 1 3 50; dec 3 3 7;"
+        Notes notes = Texts.loaded("replicas 4 4 0; inc 0 0 1; dec 3 0 2; inc 0 3 99; merge 1 0; inc 1 3 50; dec 3 3 7;"
                 + " inc 0 3 1");
         due.equal("mergedValue below zero", notes.mergedValue(0), -1);
         due.equal("mergedValue of the last counter", notes.mergedValue(3), 143);
@@ -249,7 +249,7 @@ final class MergingBoundaries {
     }
 
     private static void mergedTagsFrom0To16(Checks due) {
-        OfflineNotes notes = Worlds.empty(4, 4, 4);
+        Notes notes = Worlds.empty(4, 4, 4);
         notes.write(3, 3, 1);
         notes.decrement(3, 3, 1);
         due.equal("mergedTags of none", notes.mergedTags(), 0);
@@ -267,7 +267,7 @@ final class MergingBoundaries {
     }
 
     private static void mergedConflictsFrom0To4(Checks due) {
-        OfflineNotes notes = Worlds.empty(4, 0, 4);
+        Notes notes = Worlds.empty(4, 0, 4);
         due.equal("mergedConflicts of none", notes.mergedConflicts(), 0);
         for (int register = 0; register < 4; register++) {
             notes.write(register, register, 1);
@@ -287,7 +287,7 @@ final class MergingBoundaries {
             due.equal("convergenceErrors", Worlds.busy(count, 4, 4, 6).convergenceErrors(), 0);
         }
         due.equal("convergenceErrors of full ones", Worlds.full().convergenceErrors(), 0);
-        OfflineNotes notes = Texts.loaded("replicas 3 1 1; add 0 a; merge 1 0; remove 1 a; add 2 a; write 0 0 5; merge 2 0;"
+        Notes notes = Texts.loaded("replicas 3 1 1; add 0 a; merge 1 0; remove 1 a; add 2 a; write 0 0 5; merge 2 0;"
                 + " write 2 0 6; write 0 0 7; inc 1 0 3");
         due.equal("convergenceErrors of concurrent ones", notes.convergenceErrors(), 0);
         due.equal("the states after the question", notes.differentStates(), 3);
@@ -312,7 +312,7 @@ final class MergingBoundaries {
 
     private static void sharesFrom0To1(Checks due) {
         for (int count = 1; count <= 4; count++) {
-            OfflineNotes notes = Worlds.empty(count, 1, 1);
+            Notes notes = Worlds.empty(count, 1, 1);
             due.equalDouble("completeShare of equal ones", notes.completeShare(), 1.0f);
             notes.addTag(count - 1, 0);
             for (int replica = 0; replica < count; replica++) {
@@ -328,7 +328,7 @@ final class MergingBoundaries {
     // ---- rules of merging
 
     private static void sourceStays(Checks due) {
-        OfflineNotes notes = Worlds.full();
+        Notes notes = Worlds.full();
         String[] before = new String[4];
         for (int replica = 0; replica < 4; replica++) {
             before[replica] = Views.state(notes, replica);
@@ -343,7 +343,7 @@ final class MergingBoundaries {
     }
 
     private static void greaterSums(Checks due) {
-        OfflineNotes notes = Texts.loaded("replicas 4 4 0; inc 3 3 5; dec 3 3 7; inc 0 0 9; merge 1 3; inc 3 3 1; dec 3 3 1;"
+        Notes notes = Texts.loaded("replicas 4 4 0; inc 3 3 5; dec 3 3 7; inc 0 0 9; merge 1 3; inc 3 3 1; dec 3 3 1;"
                 + " merge 2 3");
         notes.merge(1, 2);
         due.equal("greater sums of the source", notes.increments(1, 3, 3) * 100 + notes.decrements(1, 3, 3), 608);
@@ -358,7 +358,7 @@ final class MergingBoundaries {
     }
 
     private static void liveInBoth(Checks due) {
-        OfflineNotes notes = Texts.loaded("replicas 4 0 4; add 3 p; write 3 3 0; merge 0 3; merge 1 3; add 1 a");
+        Notes notes = Texts.loaded("replicas 4 0 4; add 3 p; write 3 3 0; merge 0 3; merge 1 3; add 1 a");
         due.no("a merge of what is known", notes.merge(0, 3));
         due.equal("the dot of the tag", notes.tagDot(0, 15, 3), 1);
         due.equal("the entry of the register", notes.entryValue(0, 3, 3), 0);
@@ -368,18 +368,18 @@ final class MergingBoundaries {
     }
 
     private static void keptIfNotSeen(Checks due) {
-        OfflineNotes tag = Texts.loaded("replicas 2 0 1; add 0 a; merge 1 0; remove 1 a; add 0 a; write 0 0 5; write 1 0 6");
+        Notes tag = Texts.loaded("replicas 2 0 1; add 0 a; merge 1 0; remove 1 a; add 0 a; write 0 0 5; write 1 0 6");
         due.yes("a merge with who has seen the dot before", tag.merge(0, 1));
         due.equal("the dot whose number is 1 greater than the entry", tag.tagDot(0, 0, 0), 2);
         due.equal("the entry that the source has not seen", Texts.register(tag, 0, 0), "5|6");
-        OfflineNotes seen = Texts.loaded("replicas 2 0 1; add 0 a; write 0 0 5; merge 1 0; remove 1 a; write 1 0 6");
+        Notes seen = Texts.loaded("replicas 2 0 1; add 0 a; write 0 0 5; merge 1 0; remove 1 a; write 1 0 6");
         due.yes("a merge with who has seen both dots", seen.merge(0, 1));
         due.no("the tag whose dot the source has seen", seen.hasTag(0, 0));
         due.equal("the entry that the source has seen", Texts.register(seen, 0, 0), "6");
     }
 
     private static void addedIfNotSeen(Checks due) {
-        OfflineNotes notes = Texts.loaded("replicas 4 0 4; add 3 a; write 3 3 0; write 3 2 99; merge 0 3; remove 0 a; write 0 3 1;"
+        Notes notes = Texts.loaded("replicas 4 0 4; add 3 a; write 3 3 0; write 3 2 99; merge 0 3; remove 0 a; write 0 3 1;"
                 + " add 3 p");
         notes.merge(0, 3);
         due.equal("the dot that the target has seen and removed", notes.tagDot(0, 0, 3), 0);
@@ -389,13 +389,13 @@ final class MergingBoundaries {
         due.equal("the first dot", notes.tagDot(1, 0, 3), 1);
         due.equal("the entry with the least value", notes.entryValue(1, 3, 3), 0);
         due.equal("the entry with the greatest value", notes.entryValue(1, 2, 3), 99);
-        OfflineNotes newer = Texts.loaded("replicas 2 0 1; add 0 a; write 0 0 1; merge 1 0; add 0 a; write 0 0 2; merge 1 0");
+        Notes newer = Texts.loaded("replicas 2 0 1; add 0 a; write 0 0 1; merge 1 0; add 0 a; write 0 0 2; merge 1 0");
         due.equal("the newer dot of the same replica", newer.tagDot(1, 0, 0), 3);
         due.equal("the newer entry of the same replica", Texts.register(newer, 1, 0), "2");
     }
 
     private static void greaterEntries(Checks due) {
-        OfflineNotes notes = Texts.loaded("replicas 4 0 0; add 3 a; add 3 b; remove 3 b; add 0 c; merge 1 3; add 3 d; merge 2 1");
+        Notes notes = Texts.loaded("replicas 4 0 0; add 3 a; add 3 b; remove 3 b; add 0 c; merge 1 3; add 3 d; merge 2 1");
         notes.merge(0, 3);
         due.equal("entries of both", notes.versionEntry(0, 0) * 10 + notes.versionEntry(0, 3), 13);
         notes.merge(0, 2);

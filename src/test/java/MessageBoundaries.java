@@ -52,7 +52,7 @@ final class MessageBoundaries {
     // ---- questions
 
     private static void countsFrom0To6(Checks due) {
-        OfflineNotes notes = Worlds.empty(2, 0, 0);
+        Notes notes = Worlds.empty(2, 0, 0);
         for (int count = 0; count <= 6; count++) {
             due.equal("messageCount", notes.messageCount(), count);
             due.equal("messageCount of a busy one", Worlds.busy(2, 1, 1, count).messageCount(), count);
@@ -60,12 +60,12 @@ final class MessageBoundaries {
                 notes.send(1);
             }
         }
-        due.equal("messageCount at first", new OfflineNotes().messageCount(), 1);
+        due.equal("messageCount at first", new Notes().messageCount(), 1);
     }
 
     private static void numbersInOrder(Checks due) {
         int[] senders = {3, 0, 2, 2, 1, 3};
-        OfflineNotes notes = Worlds.empty(4, 0, 0);
+        Notes notes = Worlds.empty(4, 0, 0);
         for (int message = 0; message < 6; message++) {
             notes.send(senders[message]);
             for (int earlier = 0; earlier <= message; earlier++) {
@@ -76,7 +76,7 @@ final class MessageBoundaries {
     }
 
     private static void newsUntilCovered(Checks due) {
-        OfflineNotes notes = Texts.loaded("replicas 4 1 0; send 3; inc 3 0 1; send 3; send 3; send 3; send 3; add 3 a; remove 3 a;"
+        Notes notes = Texts.loaded("replicas 4 1 0; send 3; inc 3 0 1; send 3; send 3; send 3; send 3; add 3 a; remove 3 a;"
                 + " send 3");
         due.no("isNews of an empty state", notes.isNews(0, 0));
         due.yes("isNews of a sum", notes.isNews(1, 0));
@@ -98,7 +98,7 @@ final class MessageBoundaries {
     // ---- send
 
     private static void sixAtMost(Checks due) {
-        OfflineNotes notes = Worlds.empty(2, 0, 0);
+        Notes notes = Worlds.empty(2, 0, 0);
         for (int message = 0; message < 6; message++) {
             due.equal("send", notes.send(0), message);
         }
@@ -107,13 +107,13 @@ final class MessageBoundaries {
         notes.drop(5);
         due.equal("send after a drop", notes.send(1), 5);
         due.badState("send with 6 messages again", () -> notes.send(1));
-        OfflineNotes delivering = Worlds.busy(2, 1, 1, 6);
+        Notes delivering = Worlds.busy(2, 1, 1, 6);
         delivering.deliver(5, 0);
         due.equal("messageCount after a delivery", delivering.messageCount(), 6);
     }
 
     private static void copyOfItsTime(Checks due) {
-        OfflineNotes notes = Texts.loaded("replicas 4 4 4; add 3 p; inc 3 3 9; write 3 3 99");
+        Notes notes = Texts.loaded("replicas 4 4 4; add 3 p; inc 3 3 9; write 3 3 99");
         String sent = Views.state(notes, 3);
         notes.send(3);
         notes.removeTag(3, 15);
@@ -129,7 +129,7 @@ final class MessageBoundaries {
 
     private static void newNumbersFrom0To5(Checks due) {
         for (int count = 0; count < 6; count++) {
-            OfflineNotes notes = Worlds.busy(3, 1, 1, count);
+            Notes notes = Worlds.busy(3, 1, 1, count);
             due.equal("send with " + count + " messages", notes.send(2), count);
             due.equal("its sender", notes.senderOf(count), 2);
             due.equal("messageCount after it", notes.messageCount(), count + 1);
@@ -155,7 +155,7 @@ final class MessageBoundaries {
     // ---- deliver
 
     private static void deliveredAnyTimes(Checks due) {
-        OfflineNotes notes = Texts.loaded("replicas 2 1 0; inc 0 0 5; add 0 a; send 0");
+        Notes notes = Texts.loaded("replicas 2 1 0; inc 0 0 5; add 0 a; send 0");
         due.yes("the first delivery", notes.deliver(0, 1));
         for (int time = 2; time <= 30; time++) {
             due.no("delivery " + time, notes.deliver(0, 1));
@@ -167,7 +167,7 @@ final class MessageBoundaries {
     }
 
     private static void lateAndTwice(Checks due) {
-        OfflineNotes notes = Texts.loaded("replicas 3 1 1; add 0 a; inc 0 0 1; send 0; remove 0 a; add 0 b; inc 0 0 1; write 0 0 4;"
+        Notes notes = Texts.loaded("replicas 3 1 1; add 0 a; inc 0 0 1; send 0; remove 0 a; add 0 b; inc 0 0 1; write 0 0 4;"
                 + " send 0; write 0 0 5; send 0");
         due.yes("the last one first", notes.deliver(2, 1));
         due.no("the first one late", notes.deliver(0, 1));
@@ -180,7 +180,7 @@ final class MessageBoundaries {
     }
 
     private static void messageStays(Checks due) {
-        OfflineNotes notes = Worlds.busy(3, 1, 1, 6);
+        Notes notes = Worlds.busy(3, 1, 1, 6);
         for (int message = 0; message < 6; message++) {
             notes.deliver(message, 2);
             due.equal("messageCount after a delivery", notes.messageCount(), 6);
@@ -190,7 +190,7 @@ final class MessageBoundaries {
     }
 
     private static void deliveredToItsSender(Checks due) {
-        OfflineNotes notes = Texts.loaded("replicas 4 0 0; add 3 a; send 3; remove 3 a; add 3 b");
+        Notes notes = Texts.loaded("replicas 4 0 0; add 3 a; send 3; remove 3 a; add 3 b");
         due.no("a delivery to the sender", notes.deliver(0, 3));
         due.equal("its tags", Texts.tags(notes, 3), "b");
         due.equal("it is recorded", notes.undo(), 0);
@@ -199,7 +199,7 @@ final class MessageBoundaries {
     private static void changedOrNot(Checks due) {
         String[] changes = {"inc 3 3 1", "dec 3 3 1", "add 3 p", "remove 3 a", "write 3 3 0", "add 3 b;remove 3 b"};
         for (String change : changes) {
-            OfflineNotes notes = Texts.loaded("replicas 4 4 4;add 0 a;merge 3 0;" + change + ";send 3;send 0");
+            Notes notes = Texts.loaded("replicas 4 4 4;add 0 a;merge 3 0;" + change + ";send 3;send 0");
             due.yes("a delivery of " + change, notes.deliver(0, 0));
             due.no("the same delivery again", notes.deliver(0, 0));
             due.no("a delivery of an older state", notes.deliver(1, 3));
@@ -214,14 +214,14 @@ final class MessageBoundaries {
     // ---- drop
 
     /** Six messages; message i brings the tags up to i. */
-    private static OfflineNotes six() {
+    private static Notes six() {
         return Texts.loaded("replicas 4 0 0;add 0 a;send 0;merge 1 0;add 1 b;send 1;merge 2 1;add 2 c;send 2;merge 0 2;add 0 d;"
                 + "send 0;merge 1 0;add 1 e;send 1;merge 2 1;add 2 f;send 2");
     }
 
     private static void laterNumbersDecrease(Checks due) {
         for (int dropped = 0; dropped < 6; dropped++) {
-            OfflineNotes notes = six();
+            Notes notes = six();
             notes.drop(dropped);
             for (int message = 0; message < 5; message++) {
                 int old = message < dropped ? message : message + 1;
@@ -238,8 +238,8 @@ final class MessageBoundaries {
     }
 
     private static void leftFrom5To0(Checks due) {
-        OfflineNotes first = six();
-        OfflineNotes last = six();
+        Notes first = six();
+        Notes last = six();
         for (int left = 5; left >= 0; left--) {
             due.equal("drop of the first", first.drop(0), left);
             due.equal("drop of the last", last.drop(left), left);

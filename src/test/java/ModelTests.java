@@ -5,9 +5,11 @@ public final class ModelTests {
     private static final Checks CHECKS = new Checks("ModelTests");
     private static final int[] EDGES = {Integer.MIN_VALUE, -1, 16, 99, 100, Integer.MAX_VALUE};
     private static final int CALLS = 120;
+    private static final int LEFT_FOR_QUESTIONS = 150;
 
     private final Dice dice;
-    private final OfflineNotes notes = new OfflineNotes();
+    private final Notes notes = new Notes();
+    private Notes asked = null;
     private final ReferenceNotes model = new ReferenceNotes();
     private String calls = "";
 
@@ -36,16 +38,16 @@ public final class ModelTests {
                 run.loadText(run.worldText());
             }
             run.compareAll();
-            for (int call = 0; call < CALLS; call++) {
+            for (int call = 0; call < CALLS && run.notes.callsLeft() > LEFT_FOR_QUESTIONS; call++) {
                 run.change();
                 if (call % 6 == 0 || call > CALLS - 15) {
                     run.compareAll();
                 }
             }
         }
-        for (int seed = 1000; seed < 1060; seed++) {
+        for (int seed = 1000; seed < 1450; seed++) {
             ModelTests run = new ModelTests(seed);
-            for (int text = 0; text < 60; text++) {
+            for (int text = 0; text < 8; text++) {
                 run.loadText(run.spoilt(run.worldText()));
                 run.compareErrors();
             }
@@ -75,6 +77,15 @@ public final class ModelTests {
     private void compareChange(String call, Supplier<Object> ours, Supplier<Object> due) {
         compare(call, ours, due);
         calls += call + "; ";
+        asked = null;
+    }
+
+    /** An object like the one that is changed, which so many questions would use up. */
+    private Notes asked() {
+        if (asked == null || asked.callsLeft() == 0) {
+            asked = notes.again();
+        }
+        return asked;
     }
 
     /** Mostly a small number, sometimes one that no range holds. */
@@ -223,8 +234,8 @@ public final class ModelTests {
     }
 
     private void compareErrors() {
-        compare("errorKind()", () -> notes.errorKind(), () -> model.errorKind());
-        compare("errorOffset()", () -> notes.errorOffset(), () -> model.errorOffset());
+        compare("errorKind()", () -> asked().errorKind(), () -> model.errorKind());
+        compare("errorOffset()", () -> asked().errorOffset(), () -> model.errorOffset());
     }
 
     private void compareAll() {
@@ -240,10 +251,10 @@ public final class ModelTests {
         }
         for (int i = -1; i <= 6; i++) {
             int message = i;
-            compare("senderOf(" + i + ")", () -> notes.senderOf(message), () -> model.senderOf(message));
+            compare("senderOf(" + i + ")", () -> asked().senderOf(message), () -> model.senderOf(message));
             for (int j = -1; j <= 4; j++) {
                 int replica = j;
-                compare("isNews(" + i + ", " + j + ")", () -> notes.isNews(message, replica),
+                compare("isNews(" + i + ", " + j + ")", () -> asked().isNews(message, replica),
                         () -> model.isNews(message, replica));
             }
         }
@@ -251,55 +262,55 @@ public final class ModelTests {
     }
 
     private void compareWhole() {
-        compare("replicaCount()", () -> notes.replicaCount(), () -> model.replicaCount());
-        compare("counterCount()", () -> notes.counterCount(), () -> model.counterCount());
-        compare("registerCount()", () -> notes.registerCount(), () -> model.registerCount());
-        compare("differentStates()", () -> notes.differentStates(), () -> model.differentStates());
-        compare("mergedTags()", () -> notes.mergedTags(), () -> model.mergedTags());
-        compare("mergedConflicts()", () -> notes.mergedConflicts(), () -> model.mergedConflicts());
-        compare("convergenceErrors()", () -> notes.convergenceErrors(), () -> model.convergenceErrors());
-        compare("meanTags()", () -> notes.meanTags(), () -> model.meanTags());
-        compare("completeShare()", () -> notes.completeShare(), () -> model.completeShare());
-        compare("messageCount()", () -> notes.messageCount(), () -> model.messageCount());
+        compare("replicaCount()", () -> asked().replicaCount(), () -> model.replicaCount());
+        compare("counterCount()", () -> asked().counterCount(), () -> model.counterCount());
+        compare("registerCount()", () -> asked().registerCount(), () -> model.registerCount());
+        compare("differentStates()", () -> asked().differentStates(), () -> model.differentStates());
+        compare("mergedTags()", () -> asked().mergedTags(), () -> model.mergedTags());
+        compare("mergedConflicts()", () -> asked().mergedConflicts(), () -> model.mergedConflicts());
+        compare("convergenceErrors()", () -> asked().convergenceErrors(), () -> model.convergenceErrors());
+        compare("meanTags()", () -> asked().meanTags(), () -> model.meanTags());
+        compare("completeShare()", () -> asked().completeShare(), () -> model.completeShare());
+        compare("messageCount()", () -> asked().messageCount(), () -> model.messageCount());
     }
 
     private void compareReplica(int a) {
         String one = "(" + a + ")";
-        compare("tagCount" + one, () -> notes.tagCount(a), () -> model.tagCount(a));
-        compare("conflicts" + one, () -> notes.conflicts(a), () -> model.conflicts(a));
-        compare("mergedValue" + one, () -> notes.mergedValue(a), () -> model.mergedValue(a));
+        compare("tagCount" + one, () -> asked().tagCount(a), () -> model.tagCount(a));
+        compare("conflicts" + one, () -> asked().conflicts(a), () -> model.conflicts(a));
+        compare("mergedValue" + one, () -> asked().mergedValue(a), () -> model.mergedValue(a));
         for (int i = -1; i <= 16; i++) {
             int tag = i;
             String two = "(" + a + ", " + tag + ")";
-            compare("hasTag" + two, () -> notes.hasTag(a, tag), () -> model.hasTag(a, tag));
-            compare("liveDots" + two, () -> notes.liveDots(a, tag), () -> model.liveDots(a, tag));
-            compare("tagAt" + two, () -> notes.tagAt(a, tag), () -> model.tagAt(a, tag));
+            compare("hasTag" + two, () -> asked().hasTag(a, tag), () -> model.hasTag(a, tag));
+            compare("liveDots" + two, () -> asked().liveDots(a, tag), () -> model.liveDots(a, tag));
+            compare("tagAt" + two, () -> asked().tagAt(a, tag), () -> model.tagAt(a, tag));
             for (int j = -1; j <= 4; j++) {
                 int by = j;
-                compare("tagDot(" + a + ", " + tag + ", " + by + ")", () -> notes.tagDot(a, tag, by),
+                compare("tagDot(" + a + ", " + tag + ", " + by + ")", () -> asked().tagDot(a, tag, by),
                         () -> model.tagDot(a, tag, by));
             }
         }
     }
 
     private void comparePairs(String two, int a, int b) {
-        compare("versionEntry" + two, () -> notes.versionEntry(a, b), () -> model.versionEntry(a, b));
-        compare("areEqual" + two, () -> notes.areEqual(a, b), () -> model.areEqual(a, b));
-        compare("covers" + two, () -> notes.covers(a, b), () -> model.covers(a, b));
-        compare("areConcurrent" + two, () -> notes.areConcurrent(a, b), () -> model.areConcurrent(a, b));
-        compare("counterValue" + two, () -> notes.counterValue(a, b), () -> model.counterValue(a, b));
-        compare("entryCount" + two, () -> notes.entryCount(a, b), () -> model.entryCount(a, b));
-        compare("greatestValue" + two, () -> notes.greatestValue(a, b), () -> model.greatestValue(a, b));
-        compare("unseenDots" + two, () -> notes.unseenDots(a, b), () -> model.unseenDots(a, b));
-        compare("deltaSize" + two, () -> notes.deltaSize(a, b), () -> model.deltaSize(a, b));
-        compare("tagsGained" + two, () -> notes.tagsGained(a, b), () -> model.tagsGained(a, b));
-        compare("tagsLost" + two, () -> notes.tagsLost(a, b), () -> model.tagsLost(a, b));
+        compare("versionEntry" + two, () -> asked().versionEntry(a, b), () -> model.versionEntry(a, b));
+        compare("areEqual" + two, () -> asked().areEqual(a, b), () -> model.areEqual(a, b));
+        compare("covers" + two, () -> asked().covers(a, b), () -> model.covers(a, b));
+        compare("areConcurrent" + two, () -> asked().areConcurrent(a, b), () -> model.areConcurrent(a, b));
+        compare("counterValue" + two, () -> asked().counterValue(a, b), () -> model.counterValue(a, b));
+        compare("entryCount" + two, () -> asked().entryCount(a, b), () -> model.entryCount(a, b));
+        compare("greatestValue" + two, () -> asked().greatestValue(a, b), () -> model.greatestValue(a, b));
+        compare("unseenDots" + two, () -> asked().unseenDots(a, b), () -> model.unseenDots(a, b));
+        compare("deltaSize" + two, () -> asked().deltaSize(a, b), () -> model.deltaSize(a, b));
+        compare("tagsGained" + two, () -> asked().tagsGained(a, b), () -> model.tagsGained(a, b));
+        compare("tagsLost" + two, () -> asked().tagsLost(a, b), () -> model.tagsLost(a, b));
         for (int i = -1; i <= 4; i++) {
             int by = i;
             String three = "(" + a + ", " + b + ", " + by + ")";
-            compare("increments" + three, () -> notes.increments(a, b, by), () -> model.increments(a, b, by));
-            compare("decrements" + three, () -> notes.decrements(a, b, by), () -> model.decrements(a, b, by));
-            compare("entryValue" + three, () -> notes.entryValue(a, b, by), () -> model.entryValue(a, b, by));
+            compare("increments" + three, () -> asked().increments(a, b, by), () -> model.increments(a, b, by));
+            compare("decrements" + three, () -> asked().decrements(a, b, by), () -> model.decrements(a, b, by));
+            compare("entryValue" + three, () -> asked().entryValue(a, b, by), () -> model.entryValue(a, b, by));
         }
     }
 
@@ -314,7 +325,7 @@ public final class ModelTests {
         }
         for (int i = -1; i <= 33; i++) {
             int index = i;
-            compare("outputByte(" + i + ")", () -> notes.outputByte(index), () -> model.outputByte(index));
+            compare("outputByte(" + i + ")", () -> asked().outputByte(index), () -> model.outputByte(index));
         }
     }
 }

@@ -42,14 +42,14 @@ final class OutputBoundaries {
     // ---- tags
 
     /** Replica 0 has all tags, each with four dots. */
-    private static OfflineNotes allMerged() {
-        OfflineNotes notes = Worlds.full();
+    private static Notes allMerged() {
+        Notes notes = Worlds.full();
         notes.mergeAll();
         return notes;
     }
 
     private static void tagsReplaceTheContent(Checks due) {
-        OfflineNotes notes = allMerged();
+        Notes notes = allMerged();
         notes.writeTags(0);
         due.equal("the longest output", Views.output(notes), "a!b!c!d!e!f!g!h!i!j!k!l!m!n!o!p!");
         notes.addTag(0, 0);
@@ -67,13 +67,13 @@ final class OutputBoundaries {
     }
 
     private static void lettersFromAToP(Checks due) {
-        OfflineNotes notes = Worlds.empty(1, 0, 0);
+        Notes notes = Worlds.empty(1, 0, 0);
         for (int tag = 15; tag >= 0; tag--) {
             notes.addTag(0, tag);
             due.equal("the tags from " + tag, Texts.tags(notes, 0), "abcdefghijklmnop".substring(tag));
         }
         for (int tag = 0; tag < 16; tag++) {
-            OfflineNotes alone = Worlds.empty(2, 4, 4);
+            Notes alone = Worlds.empty(2, 4, 4);
             alone.write(1, 0, 5);
             alone.decrement(1, 3, 5);
             alone.addTag(1, tag);
@@ -83,7 +83,7 @@ final class OutputBoundaries {
     }
 
     private static void markFromTwoDotsOn(Checks due) {
-        OfflineNotes notes = Texts.loaded("replicas 4 0 0;add 0 a;add 1 a;add 2 a;add 3 a;add 3 b;add 2 p;add 3 p");
+        Notes notes = Texts.loaded("replicas 4 0 0;add 0 a;add 1 a;add 2 a;add 3 a;add 3 b;add 2 p;add 3 p");
         String[] after = {"a", "a!", "a!p", "a!bp!"};
         for (int replica = 0; replica < 4; replica++) {
             notes.merge(0, replica);
@@ -95,34 +95,34 @@ final class OutputBoundaries {
     }
 
     private static void lengthsFrom0To32(Checks due) {
-        OfflineNotes notes = allMerged();
+        Notes notes = allMerged();
         for (int tag = 0; tag < 16; tag++) {
             due.equal("writeTags", notes.writeTags(0), 32 - 2 * tag);
             notes.removeTag(0, tag);
         }
         due.equal("writeTags of none", notes.writeTags(0), 0);
-        OfflineNotes alone = Worlds.full();
+        Notes alone = Worlds.full();
         due.equal("writeTags without marks", alone.writeTags(3), 16);
     }
 
     // ---- registers
 
     private static void registerReplacesTheContent(Checks due) {
-        OfflineNotes notes = allMerged();
+        Notes notes = allMerged();
         notes.writeTags(0);
         due.equal("writeRegister after the longest output", notes.writeRegister(0, 0), 10);
         due.equal("the output of four entries", Views.output(notes), "0|10|20|30");
         notes.write(0, 0, 5);
         due.equal("writeRegister of one digit", notes.writeRegister(0, 0), 1);
         due.equal("the output of one digit", Views.output(notes), "5");
-        OfflineNotes none = Texts.loaded("replicas 1 0 1;add 0 a;add 0 b");
+        Notes none = Texts.loaded("replicas 1 0 1;add 0 a;add 0 b");
         none.writeTags(0);
         none.writeRegister(0, 0);
         due.equal("the output of no entry", Views.output(none), "-");
     }
 
     private static void entriesByReplicas(Checks due) {
-        OfflineNotes notes = Texts.loaded("replicas 4 0 4;write 3 3 1;write 2 3 50;write 0 3 99;write 1 3 0;write 3 2 7");
+        Notes notes = Texts.loaded("replicas 4 0 4;write 3 3 1;write 2 3 50;write 0 3 99;write 1 3 0;write 3 2 7");
         due.equal("the entry of replica 3", Texts.register(notes, 3, 3), "1");
         notes.merge(3, 1);
         due.equal("the entries of 1 and 3", Texts.register(notes, 3, 3), "0|1");
@@ -133,7 +133,7 @@ final class OutputBoundaries {
     }
 
     private static void valuesFrom0To99(Checks due) {
-        OfflineNotes notes = Worlds.empty(4, 0, 4);
+        Notes notes = Worlds.empty(4, 0, 4);
         for (int value = 0; value <= 99; value++) {
             notes.write(3, 3, value);
             due.equal("the digits of " + value, Texts.register(notes, 3, 3), Integer.toString(value));
@@ -141,7 +141,7 @@ final class OutputBoundaries {
     }
 
     private static void barsBetweenTwo(Checks due) {
-        OfflineNotes notes = Texts.loaded("replicas 4 0 1;write 0 0 9;write 1 0 9;write 2 0 9;write 3 0 9");
+        Notes notes = Texts.loaded("replicas 4 0 1;write 0 0 9;write 1 0 9;write 2 0 9;write 3 0 9");
         String[] after = {"9", "9|9", "9|9|9", "9|9|9|9"};
         for (int replica = 0; replica < 4; replica++) {
             notes.merge(0, replica);
@@ -151,7 +151,7 @@ final class OutputBoundaries {
     }
 
     private static void hyphenForNone(Checks due) {
-        OfflineNotes notes = Texts.loaded("replicas 4 0 4;write 3 3 0");
+        Notes notes = Texts.loaded("replicas 4 0 4;write 3 3 0");
         due.equal("writeRegister of none", notes.writeRegister(0, 3), 1);
         due.equal("the hyphen's byte", notes.outputByte(0), 45);
         due.equal("another register", Texts.register(notes, 3, 0), "-");
@@ -159,7 +159,7 @@ final class OutputBoundaries {
     }
 
     private static void lengthsFrom1To11(Checks due) {
-        OfflineNotes notes = Texts.loaded("replicas 4 0 2;write 0 0 10;write 1 0 99;write 2 0 10;write 3 0 99;write 0 1 9");
+        Notes notes = Texts.loaded("replicas 4 0 2;write 0 0 10;write 1 0 99;write 2 0 10;write 3 0 99;write 0 1 9");
         int[] lengths = {2, 5, 8, 11};
         for (int replica = 0; replica < 4; replica++) {
             notes.merge(0, replica);
@@ -178,7 +178,7 @@ final class OutputBoundaries {
     // ---- bytes
 
     private static void bytesFrom0On(Checks due) {
-        OfflineNotes notes = allMerged();
+        Notes notes = allMerged();
         notes.writeTags(0);
         for (int index = 0; index < 32; index++) {
             due.equal("outputByte(" + index + ")", notes.outputByte(index), index % 2 == 1 ? 33 : 97 + index / 2);
@@ -186,7 +186,7 @@ final class OutputBoundaries {
     }
 
     private static void outputStays(Checks due) {
-        OfflineNotes notes = new OfflineNotes();
+        Notes notes = new Notes();
         notes.merge(0, 1);
         notes.writeTags(0);
         notes.removeTag(0, 0);
@@ -201,11 +201,11 @@ final class OutputBoundaries {
     private static void outputByteThrows(Checks due) {
         int[] none = {Integer.MIN_VALUE, -1, 0, 1, 31, 32, Integer.MAX_VALUE};
         for (int index : none) {
-            due.noIndex("outputByte(" + index + ") at first", () -> new OfflineNotes().outputByte(index));
+            due.noIndex("outputByte(" + index + ") at first", () -> new Notes().outputByte(index));
         }
         Refusals.range(due, Refusals.NO_INDEX, OutputBoundaries::hyphen, 0, 0, (notes, index) -> notes.outputByte(index));
         Refusals.range(due, Refusals.NO_INDEX, OutputBoundaries::longest, 0, 31, (notes, index) -> notes.outputByte(index));
-        OfflineNotes empty = longest();
+        Notes empty = longest();
         for (int tag = 0; tag < 16; tag++) {
             empty.removeTag(0, tag);
         }
@@ -215,14 +215,14 @@ final class OutputBoundaries {
         }
     }
 
-    private static OfflineNotes hyphen() {
-        OfflineNotes notes = Worlds.empty(1, 0, 1);
+    private static Notes hyphen() {
+        Notes notes = Worlds.empty(1, 0, 1);
         notes.writeRegister(0, 0);
         return notes;
     }
 
-    private static OfflineNotes longest() {
-        OfflineNotes notes = allMerged();
+    private static Notes longest() {
+        Notes notes = allMerged();
         notes.writeTags(0);
         return notes;
     }

@@ -87,7 +87,7 @@ public final class PromiseTests {
     // ---- promises 1 to 5
 
     private static void promise1NewObject() {
-        OfflineNotes notes = new OfflineNotes();
+        Notes notes = new Notes();
         CHECKS.equal("NONE", OfflineNotes.NONE, -1);
         CHECKS.equal("replicas at first", notes.replicaCount(), 3);
         CHECKS.equal("counters at first", notes.counterCount(), 2);
@@ -102,15 +102,15 @@ public final class PromiseTests {
         CHECKS.badState("nothing to undo at first", notes::undo);
         CHECKS.badState("slot 0 at first", () -> notes.restore(0));
         CHECKS.badState("slot 1 at first", () -> notes.restore(1));
-        OfflineNotes same = Texts.loaded("replicas 3 2 1; inc 0 0 5; dec 1 0 2; add 0 a; add 1 b; send 0; merge 1 0;"
+        Notes same = Texts.loaded("replicas 3 2 1; inc 0 0 5; dec 1 0 2; add 0 a; add 1 b; send 0; merge 1 0;"
                 + " remove 1 a; add 0 a; write 0 0 7; write 2 0 9; add 2 c");
         CHECKS.equal("a new object and its text", Views.world(notes), Views.world(same));
         notes.merge(0, 1);
-        CHECKS.equal("another object stays as it is", Views.state(new OfflineNotes(), 0), Views.state(same, 0));
+        CHECKS.equal("another object stays as it is", Views.state(new Notes(), 0), Views.state(same, 0));
     }
 
     private static void promise2Append() {
-        OfflineNotes notes = new OfflineNotes();
+        Notes notes = new Notes();
         for (int i = 1; i <= 30; i++) {
             CHECKS.equal("append, call " + i, notes.append(MIN, -1, 0, 1, MAX), 20 * i);
         }
@@ -119,7 +119,7 @@ public final class PromiseTests {
         CHECKS.badArgument("load of 600 bytes", () -> notes.load(600));
         CHECKS.equal("append to an emptied buffer", notes.append(0, 0, 0, 0, 0), 20);
 
-        OfflineNotes order = new OfflineNotes();
+        Notes order = new Notes();
         // "repl" "icas" " 2 1" " 3; " "    "
         order.append(0x7265706c, 0x69636173, 0x20322031, 0x20333b20, 0x20202020);
         // "inc " "1 0 " "9;ad" "d 0 " "b   "
@@ -131,7 +131,7 @@ public final class PromiseTests {
     }
 
     private static void promise3LoadReplaces() {
-        OfflineNotes notes = new OfflineNotes();
+        Notes notes = new Notes();
         notes.writeTags(0);
         notes.save(0);
         notes.save(1);
@@ -155,7 +155,7 @@ public final class PromiseTests {
     }
 
     private static void promise3LoadThrows() {
-        OfflineNotes notes = new OfflineNotes();
+        Notes notes = new Notes();
         CHECKS.equal("a first error", Texts.error(notes, "replicas 9 1 1"), "2@9");
         notes.append(0x7265706c, 0x69636173, 0x20322031, 0x20333b20, 0x20202020);
         notes.save(1);
@@ -190,21 +190,21 @@ public final class PromiseTests {
         CHECKS.equal("no blanks at semicolons", Views.state(Texts.loaded("replicas 1 1 1;inc 0 0 1;write 0 0 9;add 0 p"), 0),
                 "2 +1-0 p2 =9 ; ");
         CHECKS.equal("leading zeros", Views.state(Texts.loaded("replicas 01 02 00; inc 00 01 09"), 0), "0 +0-0 +9-0 ; ");
-        OfflineNotes longest = new OfflineNotes();
+        Notes longest = new Notes();
         StringBuilder text = new StringBuilder("replicas 4 4 4");
         while (text.length() + 8 <= 600) {
             text.append(";add 3 a");
         }
         CHECKS.equal("the longest text", Texts.load(longest, text + " \n"), 4);
         CHECKS.equal("the dots of the longest text", longest.tagDot(3, 0, 3), 73);
-        OfflineNotes notes = new OfflineNotes();
+        Notes notes = new Notes();
         Texts.append(notes, Texts.bytes("replicas 2 0 0; add 0 a; add 0 b"));
         CHECKS.equal("load of a part", notes.load(23), 2);
         CHECKS.equal("tags of a part", Texts.tags(notes, 0), "a");
     }
 
     private static void promise3LoadRunsEachLine() {
-        OfflineNotes notes = Texts.loaded(FOUR);
+        Notes notes = Texts.loaded(FOUR);
         CHECKS.equal("inc", notes.increments(0, 3, 0), 9);
         CHECKS.equal("dec", notes.decrements(3, 3, 3), 99);
         CHECKS.equal("add by 0", notes.tagDot(0, 0, 0), 1);
@@ -214,7 +214,7 @@ public final class PromiseTests {
         CHECKS.equal("add of the last tag", Texts.tags(notes, 3), "p");
         CHECKS.equal("write", Texts.register(notes, 2, 3), "5");
         CHECKS.equal("merge is not the other way round", notes.versionEntry(0, 1), 0);
-        OfflineNotes late = Texts.loaded("replicas 3 1 1; add 0 a; send 0; add 0 b; send 0; deliver 1 1; deliver 0 2;"
+        Notes late = Texts.loaded("replicas 3 1 1; add 0 a; send 0; add 0 b; send 0; deliver 1 1; deliver 0 2;"
                 + "send 2; merge 0 0; write 1 0 0");
         CHECKS.equal("deliver of the second message", Texts.tags(late, 1), "ab");
         CHECKS.equal("deliver of the first message", Texts.tags(late, 2), "a");
@@ -224,11 +224,11 @@ public final class PromiseTests {
     }
 
     private static void errors(String[][] cases) {
-        OfflineNotes notes = new OfflineNotes();
+        Notes notes = new Notes();
         for (String[] row : cases) {
             CHECKS.equal("the error of \"" + row[0] + "\"", Texts.error(notes, row[0]), row[1]);
         }
-        CHECKS.equal("all after errors", Views.world(notes), Views.world(new OfflineNotes()));
+        CHECKS.equal("all after errors", Views.world(notes), Views.world(new Notes()));
     }
 
     private static void promise4And5SyntaxErrors() {
@@ -292,7 +292,7 @@ public final class PromiseTests {
     }
 
     private static void promise4And5ErrorIsKept() {
-        OfflineNotes notes = new OfflineNotes();
+        Notes notes = new Notes();
         CHECKS.equal("error kind at first", notes.errorKind(), 0);
         CHECKS.equal("error offset at first", notes.errorOffset(), OfflineNotes.NONE);
         CHECKS.equal("an error", Texts.error(notes, "replicas 2 1 1;remove 0 a"), "3@24");
@@ -318,7 +318,7 @@ public final class PromiseTests {
     }
 
     private static void promise9VersionEntry() {
-        OfflineNotes notes = Texts.loaded(FOUR);
+        Notes notes = Texts.loaded(FOUR);
         int[][] due = {{2, 0, 0, 0}, {2, 2, 0, 0}, {2, 0, 1, 0}, {0, 0, 0, 1}};
         for (int replica = 0; replica < 4; replica++) {
             for (int other = 0; other < 4; other++) {
@@ -328,13 +328,13 @@ public final class PromiseTests {
         }
         throwsBeyond("versionEntry of", 0, 3, replica -> notes.versionEntry(replica, 0));
         throwsBeyond("versionEntry by", 0, 3, other -> notes.versionEntry(0, other));
-        OfflineNotes two = Texts.loaded("replicas 2 1 1");
+        Notes two = Texts.loaded("replicas 2 1 1");
         throwsBeyond("versionEntry of one of two", 0, 1, replica -> two.versionEntry(replica, 0));
         throwsBeyond("versionEntry by one of two", 0, 1, other -> two.versionEntry(0, other));
     }
 
     private static void promise10AreEqual() {
-        OfflineNotes notes = Texts.loaded("replicas 3 1 1");
+        Notes notes = Texts.loaded("replicas 3 1 1");
         CHECKS.yes("areEqual of empty states", notes.areEqual(0, 1));
         notes.increment(0, 0, 1);
         CHECKS.no("areEqual after increment", notes.areEqual(0, 1));
@@ -347,16 +347,16 @@ public final class PromiseTests {
         notes.merge(0, 1);
         notes.write(0, 0, 5);
         CHECKS.no("areEqual after write", notes.areEqual(0, 1));
-        OfflineNotes seen = Texts.loaded("replicas 2 1 1; add 0 a; remove 0 a");
+        Notes seen = Texts.loaded("replicas 2 1 1; add 0 a; remove 0 a");
         CHECKS.no("areEqual with another version alone", seen.areEqual(0, 1));
-        OfflineNotes dots = Texts.loaded("replicas 2 1 1; add 0 a; merge 1 0; remove 1 a");
+        Notes dots = Texts.loaded("replicas 2 1 1; add 0 a; merge 1 0; remove 1 a");
         CHECKS.no("areEqual with another live dot alone", dots.areEqual(0, 1));
         throwsBeyond("areEqual first", 0, 2, first -> one(notes.areEqual(first, 0)));
         throwsBeyond("areEqual second", 0, 2, second -> one(notes.areEqual(0, second)));
     }
 
     private static void promise11And12CoversAndConcurrent() {
-        OfflineNotes notes = Texts.loaded("replicas 3 1 1; add 0 a; merge 1 0; inc 1 0 4");
+        Notes notes = Texts.loaded("replicas 3 1 1; add 0 a; merge 1 0; inc 1 0 4");
         CHECKS.yes("covers of one", notes.covers(2, 2));
         CHECKS.yes("covers what it merged", notes.covers(1, 0));
         CHECKS.no("covers what it has not", notes.covers(0, 1));
@@ -376,7 +376,7 @@ public final class PromiseTests {
         notes.merge(1, 2);
         CHECKS.yes("equal states cover one another", notes.covers(1, 2) && notes.covers(2, 1));
         CHECKS.no("areConcurrent of equal states", notes.areConcurrent(1, 2));
-        OfflineNotes removal = Texts.loaded("replicas 2 0 0; add 0 a; merge 1 0; remove 1 a");
+        Notes removal = Texts.loaded("replicas 2 0 0; add 0 a; merge 1 0; remove 1 a");
         CHECKS.no("a removal alone is news", removal.covers(0, 1));
         CHECKS.yes("the dot that is removed is no news", removal.covers(1, 0));
         String before = Views.world(notes);
@@ -388,7 +388,7 @@ public final class PromiseTests {
     }
 
     private static void promise13DifferentStates() {
-        OfflineNotes notes = Texts.loaded("replicas 4 1 1");
+        Notes notes = Texts.loaded("replicas 4 1 1");
         CHECKS.equal("differentStates of empty ones", notes.differentStates(), 1);
         notes.addTag(1, 0);
         CHECKS.equal("differentStates of two", notes.differentStates(), 2);
@@ -402,7 +402,7 @@ public final class PromiseTests {
     }
 
     private static void promise14CounterValue() {
-        OfflineNotes notes = Texts.loaded("replicas 3 4 0; inc 0 3 9; dec 1 3 99; inc 1 3 20; dec 0 3 1; merge 2 0");
+        Notes notes = Texts.loaded("replicas 3 4 0; inc 0 3 9; dec 1 3 99; inc 1 3 20; dec 0 3 1; merge 2 0");
         CHECKS.equal("counterValue of 0", notes.counterValue(0, 3), 8);
         CHECKS.equal("counterValue below 0", notes.counterValue(1, 3), -79);
         CHECKS.equal("counterValue merged", notes.counterValue(2, 3), 8);
@@ -411,12 +411,12 @@ public final class PromiseTests {
         CHECKS.equal("counterValue of another counter", notes.counterValue(2, 2), 0);
         throwsBeyond("counterValue of a replica", 0, 2, replica -> notes.counterValue(replica, 0));
         throwsBeyond("counterValue of a counter", 0, 3, counter -> notes.counterValue(0, counter));
-        OfflineNotes none = Texts.loaded("replicas 3 0 1");
+        Notes none = Texts.loaded("replicas 3 0 1");
         CHECKS.noIndex("counterValue without counters", () -> none.counterValue(0, 0));
     }
 
     private static void promise15And16Sums() {
-        OfflineNotes notes = Texts.loaded(
+        Notes notes = Texts.loaded(
                 "replicas 3 2 0; inc 0 0 1; inc 0 0 2; dec 0 0 4; inc 0 1 8; merge 1 0; inc 1 0 16; dec 1 1 32");
         int[][][] ups = {{{3, 0, 0}, {8, 0, 0}}, {{3, 16, 0}, {8, 0, 0}}, {{0, 0, 0}, {0, 0, 0}}};
         int[][][] downs = {{{4, 0, 0}, {0, 0, 0}}, {{4, 0, 0}, {0, 32, 0}}, {{0, 0, 0}, {0, 0, 0}}};
@@ -441,7 +441,7 @@ public final class PromiseTests {
     // ---- promises 17 to 25
 
     private static void promise17To19Dots() {
-        OfflineNotes notes = Texts.loaded("replicas 4 0 0; add 0 p; add 0 a; add 1 a; add 2 b; add 2 a; add 3 a; merge 0 1");
+        Notes notes = Texts.loaded("replicas 4 0 0; add 0 p; add 0 a; add 1 a; add 2 b; add 2 a; add 3 a; merge 0 1");
         CHECKS.yes("hasTag", notes.hasTag(0, 0));
         CHECKS.yes("hasTag of the last tag", notes.hasTag(0, 15));
         CHECKS.no("hasTag of another tag", notes.hasTag(0, 1));
@@ -469,12 +469,12 @@ public final class PromiseTests {
         throwsBeyond("tagDot of a replica", 0, 3, replica -> notes.tagDot(replica, 0, 0));
         throwsBeyond("tagDot of a tag", 0, 15, tag -> notes.tagDot(0, tag, 0));
         throwsBeyond("tagDot by", 0, 3, by -> notes.tagDot(0, 0, by));
-        OfflineNotes few = Texts.loaded("replicas 1 0 0");
+        Notes few = Texts.loaded("replicas 1 0 0");
         throwsBeyond("tagDot by the only one", 0, 0, by -> few.tagDot(0, 0, by));
     }
 
     private static void promise20And21PresentTags() {
-        OfflineNotes notes = Texts.loaded("replicas 2 0 0; add 0 p; add 0 c; add 0 f; add 1 c; merge 0 1");
+        Notes notes = Texts.loaded("replicas 2 0 0; add 0 p; add 0 c; add 0 f; add 1 c; merge 0 1");
         CHECKS.equal("tagCount", notes.tagCount(0), 3);
         CHECKS.equal("tagCount of another replica", notes.tagCount(1), 1);
         CHECKS.equal("tagAt 0", notes.tagAt(0, 0), 2);
@@ -487,10 +487,10 @@ public final class PromiseTests {
         notes.removeTag(0, 5);
         CHECKS.equal("tagCount after a removal", notes.tagCount(0), 2);
         CHECKS.equal("tagAt after a removal", notes.tagAt(0, 1), 15);
-        OfflineNotes all = Texts.loaded("replicas 1 0 0");
+        Notes all = Texts.loaded("replicas 1 0 0");
         CHECKS.equal("tagCount of none", all.tagCount(0), 0);
         CHECKS.noIndex("tagAt of none", () -> all.tagAt(0, 0));
-        OfflineNotes written = Texts.loaded("replicas 2 0 4; write 0 0 9; write 0 3 9; add 0 p; merge 1 0; remove 1 p");
+        Notes written = Texts.loaded("replicas 2 0 4; write 0 0 9; write 0 3 9; add 0 p; merge 1 0; remove 1 p");
         CHECKS.noIndex("tagAt finds no register", () -> written.tagAt(0, 1));
         CHECKS.noIndex("tagAt of none beside registers", () -> written.tagAt(1, 0));
         for (int tag = 15; tag >= 0; tag--) {
@@ -503,7 +503,7 @@ public final class PromiseTests {
     }
 
     private static void promise22To24Entries() {
-        OfflineNotes notes = Texts.loaded("replicas 4 0 4; write 0 3 0; write 1 3 50; write 2 3 20; write 3 3 50; write 0 2 1");
+        Notes notes = Texts.loaded("replicas 4 0 4; write 0 3 0; write 1 3 50; write 2 3 20; write 3 3 50; write 0 2 1");
         CHECKS.equal("entryCount of one", notes.entryCount(0, 3), 1);
         CHECKS.equal("entryCount of none", notes.entryCount(0, 0), 0);
         CHECKS.equal("entryValue of 0", notes.entryValue(0, 3, 0), 0);
@@ -526,7 +526,7 @@ public final class PromiseTests {
         notes.write(0, 3, 7);
         CHECKS.equal("greatestValue after a write", notes.greatestValue(0, 3), 7);
         CHECKS.equal("entryValue after a write", notes.entryValue(0, 3, 1), OfflineNotes.NONE);
-        OfflineNotes next = Texts.loaded("replicas 4 0 4; write 0 0 3; write 0 1 4; write 0 3 5; add 0 p; write 0 2 6");
+        Notes next = Texts.loaded("replicas 4 0 4; write 0 0 3; write 0 1 4; write 0 3 5; add 0 p; write 0 2 6");
         for (int register = 0; register < 4; register++) {
             CHECKS.equal("greatestValue beside others", next.greatestValue(0, register), new int[] {3, 4, 6, 5}[register]);
         }
@@ -537,14 +537,14 @@ public final class PromiseTests {
         throwsBeyond("entryValue by", 0, 3, by -> notes.entryValue(0, 0, by));
         throwsBeyond("greatestValue of a replica", 0, 3, replica -> notes.greatestValue(replica, 0));
         throwsBeyond("greatestValue of a register", 0, 3, register -> notes.greatestValue(0, register));
-        OfflineNotes none = Texts.loaded("replicas 2 4 0");
+        Notes none = Texts.loaded("replicas 2 4 0");
         CHECKS.noIndex("entryCount without registers", () -> none.entryCount(0, 0));
         CHECKS.noIndex("entryValue without registers", () -> none.entryValue(0, 0, 0));
         CHECKS.noIndex("greatestValue without registers", () -> none.greatestValue(0, 0));
     }
 
     private static void promise25Conflicts() {
-        OfflineNotes notes = Texts.loaded(
+        Notes notes = Texts.loaded(
                 "replicas 2 0 4; write 0 0 1; write 1 0 1; write 0 3 2; write 1 3 3; write 0 1 4; write 1 2 5; add 0 a; add 1 a");
         CHECKS.equal("conflicts before merging", notes.conflicts(0), 0);
         notes.merge(0, 1);
@@ -558,30 +558,30 @@ public final class PromiseTests {
     // ---- promises 26 to 38
 
     private static void promise26UnseenDots() {
-        OfflineNotes notes = Texts.loaded(FOUR);
+        Notes notes = Texts.loaded(FOUR);
         CHECKS.equal("unseenDots to itself", notes.unseenDots(1, 1), 0);
         CHECKS.equal("unseenDots to a replica that knows more", notes.unseenDots(0, 1), 0);
         CHECKS.equal("unseenDots to a replica that knows less", notes.unseenDots(1, 0), 2);
         CHECKS.equal("unseenDots of concurrent ones", notes.unseenDots(1, 2), 2);
         CHECKS.equal("unseenDots the other way", notes.unseenDots(2, 1), 1);
         CHECKS.equal("unseenDots of many replicas", notes.unseenDots(1, 3), 4);
-        OfflineNotes dead = Texts.loaded("replicas 2 0 1; add 0 a; remove 0 a; write 0 0 1; write 0 0 2");
+        Notes dead = Texts.loaded("replicas 2 0 1; add 0 a; remove 0 a; write 0 0 1; write 0 0 2");
         CHECKS.equal("unseenDots that are not live", dead.unseenDots(0, 1), 3);
-        OfflineNotes counted = Texts.loaded("replicas 4 1 0; inc 0 0 7; add 0 a");
+        Notes counted = Texts.loaded("replicas 4 1 0; inc 0 0 7; add 0 a");
         CHECKS.equal("unseenDots are no sums", counted.unseenDots(0, 1), 1);
         throwsBeyond("unseenDots from", 0, 3, from -> notes.unseenDots(from, 0));
         throwsBeyond("unseenDots to", 0, 3, to -> notes.unseenDots(0, to));
     }
 
     private static void promise27DeltaSize() {
-        OfflineNotes notes = new OfflineNotes();
+        Notes notes = new Notes();
         CHECKS.equal("deltaSize from 0 to 1", notes.deltaSize(0, 1), 3);
         CHECKS.equal("deltaSize from 1 to 0", notes.deltaSize(1, 0), 3);
         CHECKS.equal("deltaSize to itself", notes.deltaSize(0, 0), 0);
-        OfflineNotes sums = Texts.loaded("replicas 2 4 1; inc 0 0 1; inc 0 3 2; dec 0 3 1; dec 1 1 1");
+        Notes sums = Texts.loaded("replicas 2 4 1; inc 0 0 1; inc 0 3 2; dec 0 3 1; dec 1 1 1");
         CHECKS.equal("deltaSize of sums", sums.deltaSize(0, 1), 3);
         CHECKS.equal("deltaSize of one sum", sums.deltaSize(1, 0), 1);
-        OfflineNotes dots = Texts.loaded("replicas 3 0 4; add 0 a; add 0 p; write 0 0 1; write 0 3 2; add 1 a; merge 1 0");
+        Notes dots = Texts.loaded("replicas 3 0 4; add 0 a; add 0 p; write 0 0 1; write 0 3 2; add 1 a; merge 1 0");
         CHECKS.equal("deltaSize of dots", dots.deltaSize(0, 2), 5);
         CHECKS.equal("deltaSize of two replicas' dots", dots.deltaSize(1, 2), 7);
         CHECKS.equal("deltaSize of one replica's dots", dots.deltaSize(1, 0), 2);
@@ -594,7 +594,7 @@ public final class PromiseTests {
     }
 
     private static void promise28And29TagsGainedAndLost() {
-        OfflineNotes notes = Texts.loaded("replicas 3 0 0; add 0 a; add 0 b; add 0 c; merge 1 0; remove 1 a; remove 1 b;"
+        Notes notes = Texts.loaded("replicas 3 0 0; add 0 a; add 0 b; add 0 c; merge 1 0; remove 1 a; remove 1 b;"
                 + " add 1 d; add 0 b; add 1 c; add 1 p");
         CHECKS.equal("tagsGained", notes.tagsGained(0, 1), 2);
         CHECKS.equal("tagsLost of a removed one", notes.tagsLost(0, 1), 1);
@@ -607,7 +607,7 @@ public final class PromiseTests {
         CHECKS.equal("nothing is gained by asking", Texts.tags(notes, 0), "abc");
         notes.merge(0, 1);
         CHECKS.equal("tags after the merge", Texts.tags(notes, 0), "bcdp");
-        OfflineNotes written = Texts.loaded("replicas 2 0 1; write 0 0 9; add 0 b; add 1 p");
+        Notes written = Texts.loaded("replicas 2 0 1; write 0 0 9; add 0 b; add 1 p");
         CHECKS.equal("tagsGained has no registers", written.tagsGained(1, 0), 1);
         CHECKS.equal("tagsLost has no registers", written.tagsLost(0, 1), 0);
         throwsBeyond("tagsGained target", 0, 2, target -> notes.tagsGained(target, 0));
@@ -617,7 +617,7 @@ public final class PromiseTests {
     }
 
     private static void promise30To32AllMerged() {
-        OfflineNotes notes = Texts.loaded(FOUR + "; dec 2 0 7; merge 3 2; add 0 d");
+        Notes notes = Texts.loaded(FOUR + "; dec 2 0 7; merge 3 2; add 0 d");
         String before = Views.world(notes);
         CHECKS.equal("mergedValue", notes.mergedValue(3), -90);
         CHECKS.equal("mergedValue of one replica", notes.mergedValue(0), -7);
@@ -626,7 +626,7 @@ public final class PromiseTests {
         CHECKS.equal("mergedConflicts", notes.mergedConflicts(), 1);
         CHECKS.equal("nothing is merged by asking", Views.world(notes), before);
         throwsBeyond("mergedValue", 0, 3, counter -> notes.mergedValue(counter));
-        OfflineNotes removed = Texts.loaded("replicas 3 0 2; add 0 a; write 0 0 1; write 0 1 1; merge 2 0; remove 2 a;"
+        Notes removed = Texts.loaded("replicas 3 0 2; add 0 a; write 0 0 1; write 0 1 1; merge 2 0; remove 2 a;"
                 + " write 2 0 5; write 1 1 1");
         CHECKS.equal("mergedTags after a removal", removed.mergedTags(), 0);
         removed.addTag(1, 4);
@@ -635,14 +635,14 @@ public final class PromiseTests {
         CHECKS.equal("mergedTags after undo", removed.mergedTags(), 0);
         CHECKS.equal("mergedConflicts after a later write", removed.mergedConflicts(), 1);
         CHECKS.noIndex("mergedValue without counters", () -> removed.mergedValue(0));
-        OfflineNotes alone = Texts.loaded("replicas 1 1 1; add 0 a; add 0 b; inc 0 0 3; write 0 0 1");
+        Notes alone = Texts.loaded("replicas 1 1 1; add 0 a; add 0 b; inc 0 0 3; write 0 0 1");
         CHECKS.equal("merged of one replica", alone.mergedTags() + alone.mergedValue(0) + alone.mergedConflicts(), 5);
     }
 
     private static void promise33ConvergenceErrors() {
-        OfflineNotes notes = Texts.loaded(FOUR);
+        Notes notes = Texts.loaded(FOUR);
         CHECKS.equal("convergenceErrors", notes.convergenceErrors(), 0);
-        CHECKS.equal("convergenceErrors at first", new OfflineNotes().convergenceErrors(), 0);
+        CHECKS.equal("convergenceErrors at first", new Notes().convergenceErrors(), 0);
         notes.addTag(0, 0);
         notes.write(3, 3, 1);
         CHECKS.equal("convergenceErrors later", notes.convergenceErrors(), 0);
@@ -653,19 +653,19 @@ public final class PromiseTests {
     }
 
     private static void promise34MeanTags() {
-        CHECKS.equalDouble("meanTags at first", new OfflineNotes().meanTags(), 1.0);
+        CHECKS.equalDouble("meanTags at first", new Notes().meanTags(), 1.0);
         CHECKS.equalDouble("meanTags of none", Texts.loaded("replicas 4 0 0").meanTags(), 0.0);
         CHECKS.equalDouble("meanTags of thirds", Texts.loaded("replicas 3 0 0; add 0 a; add 2 b").meanTags(), 2.0 / 3.0);
-        OfflineNotes notes = Texts.loaded("replicas 4 0 0; add 0 a; add 0 b; add 1 a; merge 3 0; merge 3 1; remove 0 b");
+        Notes notes = Texts.loaded("replicas 4 0 0; add 0 a; add 0 b; add 1 a; merge 3 0; merge 3 1; remove 0 b");
         CHECKS.equalDouble("meanTags of quarters", notes.meanTags(), 1.0);
         notes.addTag(2, 15);
         CHECKS.equalDouble("meanTags of five quarters", notes.meanTags(), 1.25);
     }
 
     private static void promise35CompleteShare() {
-        CHECKS.equalDouble("completeShare at first", new OfflineNotes().completeShare(), 0.0f);
+        CHECKS.equalDouble("completeShare at first", new Notes().completeShare(), 0.0f);
         CHECKS.equalDouble("completeShare of empty ones", Texts.loaded("replicas 3 0 0").completeShare(), 1.0f);
-        OfflineNotes notes = Texts.loaded("replicas 3 1 1; add 0 a; merge 2 0; inc 1 0 1");
+        Notes notes = Texts.loaded("replicas 3 1 1; add 0 a; merge 2 0; inc 1 0 1");
         CHECKS.equalDouble("completeShare of none", notes.completeShare(), 0.0f);
         notes.merge(2, 1);
         CHECKS.equalDouble("completeShare of a third", notes.completeShare(), 1.0f / 3.0f);
@@ -683,7 +683,7 @@ public final class PromiseTests {
     }
 
     private static void promise36To38Messages() {
-        OfflineNotes notes = Texts.loaded("replicas 3 1 1; add 0 a; send 0; merge 1 0; remove 1 a; send 1; inc 2 0 1; send 2");
+        Notes notes = Texts.loaded("replicas 3 1 1; add 0 a; send 0; merge 1 0; remove 1 a; send 1; inc 2 0 1; send 2");
         CHECKS.equal("messageCount", notes.messageCount(), 3);
         for (int message = 0; message < 3; message++) {
             CHECKS.equal("senderOf(" + message + ")", notes.senderOf(message), message);
@@ -698,7 +698,7 @@ public final class PromiseTests {
         throwsBeyond("senderOf", 0, 2, message -> notes.senderOf(message));
         throwsBeyond("isNews of a message", 0, 2, message -> one(notes.isNews(message, 0)));
         throwsBeyond("isNews to a replica", 0, 2, replica -> one(notes.isNews(0, replica)));
-        OfflineNotes none = Texts.loaded("replicas 3 1 1");
+        Notes none = Texts.loaded("replicas 3 1 1");
         CHECKS.equal("messageCount of none", none.messageCount(), 0);
         CHECKS.noIndex("senderOf without messages", () -> none.senderOf(0));
         CHECKS.noIndex("isNews without messages", () -> none.isNews(0, 0));
@@ -707,7 +707,7 @@ public final class PromiseTests {
     // ---- promises 39 to 49
 
     private static void promise39And40ChangeACounter() {
-        OfflineNotes notes = Texts.loaded("replicas 2 4 1; inc 1 3 10; merge 0 1");
+        Notes notes = Texts.loaded("replicas 2 4 1; inc 1 3 10; merge 0 1");
         CHECKS.equal("increment by 1", notes.increment(0, 3, 1), 11);
         CHECKS.equal("increment by 99", notes.increment(0, 3, 99), 110);
         CHECKS.equal("decrement by 99", notes.decrement(1, 3, 99), -89);
@@ -738,7 +738,7 @@ public final class PromiseTests {
     }
 
     private static void promise41AddTag() {
-        OfflineNotes notes = Texts.loaded("replicas 3 1 1; add 0 a; add 1 a; merge 0 1");
+        Notes notes = Texts.loaded("replicas 3 1 1; add 0 a; add 1 a; merge 0 1");
         CHECKS.equal("addTag of a present tag", notes.addTag(0, 0), 2);
         CHECKS.equal("its only live dot", notes.liveDots(0, 0), 1);
         CHECKS.equal("its new dot", notes.tagDot(0, 0, 0), 2);
@@ -759,7 +759,7 @@ public final class PromiseTests {
     }
 
     private static void promise42RemoveTag() {
-        OfflineNotes notes = Texts.loaded("replicas 3 1 1; add 0 a; add 1 a; add 2 a; merge 0 1; merge 0 2; add 0 p; add 1 b");
+        Notes notes = Texts.loaded("replicas 3 1 1; add 0 a; add 1 a; add 2 a; merge 0 1; merge 0 2; add 0 p; add 1 b");
         CHECKS.equal("removeTag of three dots", notes.removeTag(0, 0), 3);
         CHECKS.equal("the tags after it", Texts.tags(notes, 0), "p");
         CHECKS.equal("the version after it", notes.versionEntry(0, 0), 2);
@@ -777,7 +777,7 @@ public final class PromiseTests {
     }
 
     private static void promise43Write() {
-        OfflineNotes notes = Texts.loaded("replicas 3 1 4; write 0 3 1; write 1 3 2; write 2 3 3; merge 0 1; merge 0 2");
+        Notes notes = Texts.loaded("replicas 3 1 4; write 0 3 1; write 1 3 2; write 2 3 3; merge 0 1; merge 0 2");
         CHECKS.equal("write over three entries", notes.write(0, 3, 99), 3);
         CHECKS.equal("the entry after it", Texts.register(notes, 0, 3), "99");
         CHECKS.equal("the version after it", notes.versionEntry(0, 0), 2);
@@ -797,12 +797,12 @@ public final class PromiseTests {
         }
         CHECKS.noIndex("write of replica 3", () -> notes.write(3, 0, 1));
         CHECKS.equal("a wrong write is not recorded", notes.undo(), 2);
-        OfflineNotes none = Texts.loaded("replicas 1 1 0");
+        Notes none = Texts.loaded("replicas 1 1 0");
         CHECKS.noIndex("write without registers", () -> none.write(0, 0, 1));
     }
 
     private static void promise44Merge() {
-        OfflineNotes notes = new OfflineNotes();
+        Notes notes = new Notes();
         String source = Views.state(notes, 0);
         CHECKS.yes("merge of news", notes.merge(1, 0));
         CHECKS.equal("the source of a merge", Views.state(notes, 0), source);
@@ -817,7 +817,7 @@ public final class PromiseTests {
     }
 
     private static void promise44MergeRules() {
-        OfflineNotes dots = Texts.loaded("replicas 3 0 1; add 0 a; merge 1 0; merge 2 0; remove 1 a; add 2 a");
+        Notes dots = Texts.loaded("replicas 3 0 1; add 0 a; merge 1 0; merge 2 0; remove 1 a; add 2 a");
         dots.merge(0, 1);
         CHECKS.no("a dot that the source has seen and removed", dots.hasTag(0, 0));
         CHECKS.yes("a merge of a later dot", dots.merge(0, 2));
@@ -825,13 +825,13 @@ public final class PromiseTests {
         CHECKS.equal("the dot that it replaced", dots.tagDot(0, 0, 0), 0);
         CHECKS.no("a merge of the removal of an older dot", dots.merge(2, 1));
         CHECKS.yes("the dot that the source has not seen", dots.hasTag(2, 0));
-        OfflineNotes again = Texts.loaded("replicas 2 0 0; add 0 a; merge 1 0; remove 0 a; add 0 a");
+        Notes again = Texts.loaded("replicas 2 0 0; add 0 a; merge 1 0; remove 0 a; add 0 a");
         again.merge(1, 0);
         CHECKS.equal("a newer dot of the same replica", again.tagDot(1, 0, 0), 2);
-        OfflineNotes old = Texts.loaded("replicas 2 0 0; add 0 a; merge 1 0; add 0 b; remove 0 a");
+        Notes old = Texts.loaded("replicas 2 0 0; add 0 a; merge 1 0; add 0 b; remove 0 a");
         CHECKS.no("a merge of an older state", old.merge(0, 1));
         CHECKS.equal("tags after it", Texts.tags(old, 0), "b");
-        OfflineNotes values = Texts.loaded("replicas 3 0 1; write 0 0 10; merge 1 0; merge 2 0; write 1 0 11; write 2 0 12");
+        Notes values = Texts.loaded("replicas 3 0 1; write 0 0 10; merge 1 0; merge 2 0; write 1 0 11; write 2 0 12");
         values.merge(1, 2);
         CHECKS.equal("concurrent values", Texts.register(values, 1, 0), "11|12");
         values.merge(0, 1);
@@ -840,15 +840,15 @@ public final class PromiseTests {
         CHECKS.no("a merge of replaced values", values.merge(0, 2));
         values.merge(2, 0);
         CHECKS.equal("the value that replaced them", Texts.register(values, 2, 0), "13");
-        OfflineNotes sums = Texts.loaded("replicas 2 1 0; inc 0 0 5; dec 0 0 2; merge 1 0; inc 0 0 5; inc 1 0 1; dec 1 0 9");
+        Notes sums = Texts.loaded("replicas 2 1 0; inc 0 0 5; dec 0 0 2; merge 1 0; inc 0 0 5; inc 1 0 1; dec 1 0 9");
         sums.merge(1, 0);
         CHECKS.equal("the greater sums", Views.state(sums, 1), "0 +10-2 ; 0 +1-9 ; ");
-        OfflineNotes version = Texts.loaded("replicas 2 0 0; add 0 a; add 0 b; remove 0 b; merge 1 0; add 1 c; merge 0 1");
+        Notes version = Texts.loaded("replicas 2 0 0; add 0 a; add 0 b; remove 0 b; merge 1 0; add 1 c; merge 0 1");
         CHECKS.equal("the greater entries", Views.state(version, 0), "2 a1 ; 1 c1 ; ");
     }
 
     private static void promise45MergeAll() {
-        OfflineNotes notes = Texts.loaded(FOUR);
+        Notes notes = Texts.loaded(FOUR);
         CHECKS.equal("mergeAll of four", notes.mergeAll(), 4);
         CHECKS.equal("states after it", notes.differentStates(), 1);
         CHECKS.equal("a state after it", Views.state(notes, 2), "2 +0-0 +0-0 +0-0 +9-0 =-1 =-1 =-1 =-1 ; "
@@ -863,7 +863,7 @@ public final class PromiseTests {
     }
 
     private static void promise46Send() {
-        OfflineNotes notes = Texts.loaded("replicas 3 0 0; add 0 a");
+        Notes notes = Texts.loaded("replicas 3 0 0; add 0 a");
         for (int message = 0; message < 6; message++) {
             CHECKS.equal("send", notes.send(message % 3), message);
         }
@@ -882,7 +882,7 @@ public final class PromiseTests {
     }
 
     private static void promise47Deliver() {
-        OfflineNotes notes = Texts.loaded("replicas 3 1 1; add 0 a; send 0; add 0 b; inc 0 0 3; write 0 0 8; send 0; remove 0 a");
+        Notes notes = Texts.loaded("replicas 3 1 1; add 0 a; send 0; add 0 b; inc 0 0 3; write 0 0 8; send 0; remove 0 a");
         CHECKS.no("deliver to the sender", notes.deliver(0, 0));
         CHECKS.equal("tags of the sender", Texts.tags(notes, 0), "b");
         CHECKS.yes("deliver of the later message", notes.deliver(1, 1));
@@ -901,7 +901,7 @@ public final class PromiseTests {
     }
 
     private static void promise48Drop() {
-        OfflineNotes notes = Texts.loaded(
+        Notes notes = Texts.loaded(
                 "replicas 4 0 0; add 0 a; send 0; add 1 b; send 1; add 2 c; send 2; add 3 d; send 3; send 0; send 1");
         CHECKS.equal("drop in the middle", notes.drop(1), 5);
         CHECKS.equal("the numbers of the others", "" + notes.senderOf(0) + notes.senderOf(1) + notes.senderOf(2)
@@ -922,7 +922,7 @@ public final class PromiseTests {
         CHECKS.equal("senders after undo", notes.senderOf(3), 3);
         CHECKS.equal("drop of all", notes.drop(0) + notes.drop(0) + notes.drop(0) + notes.drop(0), 6);
         CHECKS.noIndex("drop of none", () -> notes.drop(0));
-        OfflineNotes full = Texts.loaded("replicas 3 0 0; send 0; send 0; send 0; send 0; add 1 a; send 1; add 1 b; send 1");
+        Notes full = Texts.loaded("replicas 3 0 0; send 0; send 0; send 0; send 0; add 1 a; send 1; add 1 b; send 1");
         full.drop(0);
         full.addTag(2, 12);
         CHECKS.equal("send after drop from six", full.send(2), 5);
@@ -933,7 +933,7 @@ public final class PromiseTests {
     }
 
     private static void promise49Restore() {
-        OfflineNotes notes = new OfflineNotes();
+        Notes notes = new Notes();
         notes.save(1);
         String before = Views.world(notes);
         notes.mergeAll();
@@ -959,7 +959,7 @@ public final class PromiseTests {
     // ---- promises 50 to 54
 
     private static void promise50Undo() {
-        OfflineNotes notes = new OfflineNotes();
+        Notes notes = new Notes();
         CHECKS.badState("undo of nothing", notes::undo);
         String[] worlds = new String[14];
         for (int change = 0; change < 13; change++) {
@@ -982,7 +982,7 @@ public final class PromiseTests {
     }
 
     private static void promise50UndoTakesBackEachChange() {
-        OfflineNotes notes = new OfflineNotes();
+        Notes notes = new Notes();
         notes.save(0);
         notes.addTag(1, 7);
         String before = Views.world(notes);
@@ -1012,7 +1012,7 @@ public final class PromiseTests {
     }
 
     private static void promise50OnlyChangesAreRecorded() {
-        OfflineNotes notes = Texts.loaded("replicas 2 1 1; add 0 a; send 0; merge 1 0");
+        Notes notes = Texts.loaded("replicas 2 1 1; add 0 a; send 0; merge 1 0");
         notes.save(0);
         notes.writeTags(0);
         notes.writeRegister(0, 0);
@@ -1034,7 +1034,7 @@ public final class PromiseTests {
     }
 
     private static void promise51Save() {
-        OfflineNotes notes = new OfflineNotes();
+        Notes notes = new Notes();
         String first = Views.world(notes);
         CHECKS.equal("save", notes.save(0), 1);
         notes.send(1);
@@ -1059,7 +1059,7 @@ public final class PromiseTests {
     }
 
     private static void promise52WriteTags() {
-        OfflineNotes notes = Texts.loaded("replicas 3 0 1; add 0 p; add 0 b; add 1 b; add 1 a; add 2 c; merge 0 1");
+        Notes notes = Texts.loaded("replicas 3 0 1; add 0 p; add 0 b; add 1 b; add 1 a; add 2 c; merge 0 1");
         CHECKS.equal("writeTags", notes.writeTags(0), 4);
         CHECKS.equal("the tags", Texts.output(notes, 4), "ab!p");
         CHECKS.equal("writeTags of one", notes.writeTags(2), 1);
@@ -1069,7 +1069,7 @@ public final class PromiseTests {
             CHECKS.noIndex("writeTags(" + wrong + ")", () -> notes.writeTags(wrong));
         }
         CHECKS.equal("the output after a wrong call", notes.outputByte(0), 'c');
-        OfflineNotes all = Texts.loaded("replicas 2 0 0");
+        Notes all = Texts.loaded("replicas 2 0 0");
         CHECKS.equal("writeTags of none", all.writeTags(0), 0);
         CHECKS.noIndex("the output of none", () -> all.outputByte(0));
         for (int tag = 0; tag < 16; tag++) {
@@ -1083,7 +1083,7 @@ public final class PromiseTests {
     }
 
     private static void promise53WriteRegister() {
-        OfflineNotes notes = Texts.loaded("replicas 4 0 2; write 0 1 10; write 1 1 0; write 2 1 9; write 3 1 99");
+        Notes notes = Texts.loaded("replicas 4 0 2; write 0 1 10; write 1 1 0; write 2 1 9; write 3 1 99");
         CHECKS.equal("writeRegister of none", notes.writeRegister(0, 0), 1);
         CHECKS.equal("a hyphen", notes.outputByte(0), 45);
         CHECKS.equal("writeRegister of 10", Texts.register(notes, 0, 1), "10");
@@ -1106,7 +1106,7 @@ public final class PromiseTests {
     }
 
     private static void promise54OutputByte() {
-        OfflineNotes notes = new OfflineNotes();
+        Notes notes = new Notes();
         for (int wrong : new int[] {MIN, -1, 0, MAX}) {
             CHECKS.noIndex("outputByte(" + wrong + ") at first", () -> notes.outputByte(wrong));
         }
@@ -1123,10 +1123,10 @@ public final class PromiseTests {
 
     /** Texts of all bytes at all places end in an answer, never in what the machine throws. */
     private static void anyArgumentsAreAnswered() {
-        OfflineNotes notes = new OfflineNotes();
         String text = "replicas 3 2 1;remove 0 a";
         for (int at = 0; at < text.length(); at++) {
             for (int sign = 0; sign < 256; sign++) {
+                Notes notes = new Notes();
                 String changed = text.substring(0, at) + (char) sign + text.substring(at + 1);
                 String error = Texts.error(notes, changed);
                 CHECKS.yes("the error of \"" + changed + "\" is " + error,

@@ -3,11 +3,11 @@ import java.util.function.Supplier;
 /** Calls that must change nothing: those on the wrong side of a range of arguments, and questions. */
 final class Refusals {
     interface Use {
-        Object of(OfflineNotes notes);
+        Object of(Notes notes);
     }
 
     interface UseOf {
-        Object of(OfflineNotes notes, int number);
+        Object of(Notes notes, int number);
     }
 
     static final Class<IndexOutOfBoundsException> NO_INDEX = IndexOutOfBoundsException.class;
@@ -18,27 +18,21 @@ final class Refusals {
     }
 
     /** A refused call on an object, which is compared with another one that was made in the same way. */
-    static void refused(Checks due, Class<? extends RuntimeException> why, Supplier<OfflineNotes> made, String what,
+    static void refused(Checks due, Class<? extends RuntimeException> why, Supplier<Notes> made, String what,
             Use call) {
-        OfflineNotes notes = made.get();
+        Notes notes = made.get();
         due.fails(what, why, () -> call.of(notes));
         due.equal("all after " + what, Views.everything(notes), Views.everything(made.get()));
-        OfflineNotes sending = made.get();
-        due.fails(what, why, () -> call.of(sending));
-        due.equal("the messages after " + what, Views.messages(sending), Views.messages(made.get()));
     }
 
     /** A question, behind which an object is compared with another one that has not been asked. */
-    static void unchanged(Checks due, Supplier<OfflineNotes> made, Use question) {
-        OfflineNotes notes = made.get();
+    static void unchanged(Checks due, Supplier<Notes> made, Use question) {
+        Notes notes = made.get();
         answered(due, notes, "the question", question);
         due.equal("all after the question", Views.everything(notes), Views.everything(made.get()));
-        OfflineNotes sending = made.get();
-        answered(due, sending, "the question", question);
-        due.equal("the messages after the question", Views.messages(sending), Views.messages(made.get()));
     }
 
-    static void answered(Checks due, OfflineNotes notes, String what, Use call) {
+    static void answered(Checks due, Notes notes, String what, Use call) {
         String thrown = "";
         try {
             call.of(notes);
@@ -48,7 +42,7 @@ final class Refusals {
         due.equal("what " + what + " threw", thrown, "");
     }
 
-    static void range(Checks due, Class<? extends RuntimeException> why, Supplier<OfflineNotes> made, int first,
+    static void range(Checks due, Class<? extends RuntimeException> why, Supplier<Notes> made, int first,
             int last, UseOf call) {
         for (int number : new int[] {first, last}) {
             if (first <= last) {

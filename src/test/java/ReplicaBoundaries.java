@@ -58,10 +58,10 @@ final class ReplicaBoundaries {
     // ---- numbers of things
 
     private static void replicasFrom1To4(Checks due) {
-        due.equal("no replica", Texts.error(new OfflineNotes(), "replicas 0 1 1"), "2@9");
-        due.equal("five replicas", Texts.error(new OfflineNotes(), "replicas 5 1 1"), "2@9");
+        due.equal("no replica", Texts.error(new Notes(), "replicas 0 1 1"), "2@9");
+        due.equal("five replicas", Texts.error(new Notes(), "replicas 5 1 1"), "2@9");
         for (int count = 1; count <= 4; count++) {
-            OfflineNotes notes = Worlds.empty(count, 0, 0);
+            Notes notes = Worlds.empty(count, 0, 0);
             int beyond = count;
             due.equal("the first replica", notes.addTag(0, 0), 1);
             due.equal("the last of " + count, notes.addTag(count - 1, 0), count == 1 ? 2 : 1);
@@ -77,9 +77,9 @@ final class ReplicaBoundaries {
     }
 
     private static void countersFrom0To4(Checks due) {
-        due.equal("five counters", Texts.error(new OfflineNotes(), "replicas 1 5 1"), "2@11");
+        due.equal("five counters", Texts.error(new Notes(), "replicas 1 5 1"), "2@11");
         for (int count = 0; count <= 4; count++) {
-            OfflineNotes notes = Worlds.empty(2, count, 1);
+            Notes notes = Worlds.empty(2, count, 1);
             int beyond = count;
             if (count > 0) {
                 due.equal("the last of " + count, notes.increment(0, count - 1, 7), 7);
@@ -97,9 +97,9 @@ final class ReplicaBoundaries {
     }
 
     private static void registersFrom0To4(Checks due) {
-        due.equal("five registers", Texts.error(new OfflineNotes(), "replicas 1 1 5"), "2@13");
+        due.equal("five registers", Texts.error(new Notes(), "replicas 1 1 5"), "2@13");
         for (int count = 0; count <= 4; count++) {
-            OfflineNotes notes = Worlds.empty(2, 1, count);
+            Notes notes = Worlds.empty(2, 1, count);
             int beyond = count;
             if (count > 0) {
                 due.equal("the last of " + count, notes.write(0, count - 1, 7), 0);
@@ -119,7 +119,7 @@ final class ReplicaBoundaries {
     // ---- states
 
     private static void greatestNumberIsTheEntry(Checks due) {
-        OfflineNotes notes = Texts.loaded("replicas 4 0 1; add 3 a; add 3 a; write 3 0 1; remove 3 a; merge 0 3; add 3 b");
+        Notes notes = Texts.loaded("replicas 4 0 1; add 3 a; add 3 a; write 3 0 1; remove 3 a; merge 0 3; add 3 b");
         due.equal("its own entry", notes.versionEntry(3, 3), 4);
         due.equal("the entry that another one has seen", notes.versionEntry(0, 3), 3);
         due.equal("the entry that is not seen", notes.versionEntry(1, 3), 0);
@@ -130,7 +130,7 @@ final class ReplicaBoundaries {
 
     private static void entriesAreZeroAtFirst(Checks due) {
         for (int count = 1; count <= 4; count++) {
-            OfflineNotes notes = Worlds.empty(count, 1, 1);
+            Notes notes = Worlds.empty(count, 1, 1);
             for (int replica = 0; replica < count; replica++) {
                 for (int other = 0; other < count; other++) {
                     due.equal("the entry at first", notes.versionEntry(replica, other), 0);
@@ -146,26 +146,26 @@ final class ReplicaBoundaries {
     }
 
     private static void oneDifferenceIsEnough(Checks due) {
-        OfflineNotes version = Texts.loaded("replicas 2 0 0; add 0 a; remove 0 a");
+        Notes version = Texts.loaded("replicas 2 0 0; add 0 a; remove 0 a");
         due.no("areEqual with another entry alone", version.areEqual(0, 1));
-        OfflineNotes sum = Texts.loaded("replicas 4 4 0; inc 3 3 1");
+        Notes sum = Texts.loaded("replicas 4 4 0; inc 3 3 1");
         due.no("areEqual with another increment alone", sum.areEqual(0, 3));
-        OfflineNotes less = Texts.loaded("replicas 4 4 0; dec 3 3 1");
+        Notes less = Texts.loaded("replicas 4 4 0; dec 3 3 1");
         due.no("areEqual with another decrement alone", less.areEqual(3, 0));
-        OfflineNotes dot = Texts.loaded("replicas 2 0 0; add 0 p; merge 1 0; remove 1 p");
+        Notes dot = Texts.loaded("replicas 2 0 0; add 0 p; merge 1 0; remove 1 p");
         due.no("areEqual with another live dot of a tag alone", dot.areEqual(0, 1));
-        OfflineNotes entry = Texts.loaded("replicas 4 4 4; write 3 3 0; merge 0 3; merge 1 0; add 1 a; write 0 3 0; merge 2 0");
+        Notes entry = Texts.loaded("replicas 4 4 4; write 3 3 0; merge 0 3; merge 1 0; add 1 a; write 0 3 0; merge 2 0");
         due.no("areEqual with another live dot of a register", entry.areEqual(3, 0));
         due.yes("areEqual with nothing else", entry.areEqual(2, 0));
-        OfflineNotes empty = Worlds.empty(4, 4, 4);
+        Notes empty = Worlds.empty(4, 4, 4);
         due.yes("areEqual of empty states", empty.areEqual(0, 3));
-        OfflineNotes same = Texts.loaded("replicas 2 1 1; inc 0 0 5; inc 1 0 5; add 0 a; add 1 a; write 0 0 5; write 1 0 5");
+        Notes same = Texts.loaded("replicas 2 1 1; inc 0 0 5; inc 1 0 5; add 0 a; add 1 a; write 0 0 5; write 1 0 5");
         due.no("areEqual of states with the same values", same.areEqual(0, 1));
     }
 
     private static void areEqualWithItself(Checks due) {
         for (int replica = 0; replica < 3; replica++) {
-            due.yes("areEqual with itself", new OfflineNotes().areEqual(replica, replica));
+            due.yes("areEqual with itself", new Notes().areEqual(replica, replica));
         }
     }
 
@@ -178,21 +178,21 @@ final class ReplicaBoundaries {
         String[] changes = {"inc 3 3 1", "dec 3 3 1", "add 3 p", "remove 3 a", "write 3 3 0", "add 3 a", "add 3 b;remove 3 b"};
         for (String change : changes) {
             String text = "replicas 4 4 4;add 0 a;write 0 3 0;inc 0 0 1;merge 3 0;";
-            OfflineNotes notes = Texts.loaded(text + change);
+            Notes notes = Texts.loaded(text + change);
             due.no("covers before " + change, notes.covers(0, 3));
             due.yes("covers of the one with " + change, notes.covers(3, 0));
             String before = Views.everything(Texts.loaded(text + change));
             due.equal("all after the question", Views.everything(notes), before);
-            OfflineNotes merged = Texts.loaded(text + change + ";merge 0 3");
+            Notes merged = Texts.loaded(text + change + ";merge 0 3");
             due.yes("covers after a merge of " + change, merged.covers(0, 3) && merged.covers(3, 0));
         }
-        OfflineNotes empty = Worlds.empty(4, 4, 4);
+        Notes empty = Worlds.empty(4, 4, 4);
         due.yes("covers of empty states", empty.covers(0, 3) && empty.covers(3, 0));
     }
 
     private static void coversItself(Checks due) {
         for (int replica = 0; replica < 3; replica++) {
-            due.yes("covers of itself", new OfflineNotes().covers(replica, replica));
+            due.yes("covers of itself", new Notes().covers(replica, replica));
         }
     }
 
@@ -202,7 +202,7 @@ final class ReplicaBoundaries {
     }
 
     private static void neitherCovers(Checks due) {
-        OfflineNotes notes = Texts.loaded("replicas 4 1 0; inc 0 0 1; merge 1 0; add 1 a; dec 2 0 1");
+        Notes notes = Texts.loaded("replicas 4 1 0; inc 0 0 1; merge 1 0; add 1 a; dec 2 0 1");
         due.no("areConcurrent if the second covers the first", notes.areConcurrent(0, 1));
         due.no("areConcurrent if the first covers the second", notes.areConcurrent(1, 0));
         due.yes("areConcurrent if neither covers", notes.areConcurrent(1, 2));
@@ -210,13 +210,13 @@ final class ReplicaBoundaries {
         due.no("areConcurrent with an empty state", notes.areConcurrent(3, 2));
         notes.mergeAll();
         due.no("areConcurrent if both cover", notes.areConcurrent(1, 2));
-        OfflineNotes removals = Texts.loaded("replicas 3 0 0; add 0 a; add 0 b; merge 1 0; merge 2 0; remove 1 a; remove 2 b");
+        Notes removals = Texts.loaded("replicas 3 0 0; add 0 a; add 0 b; merge 1 0; merge 2 0; remove 1 a; remove 2 b");
         due.yes("areConcurrent by removals alone", removals.areConcurrent(1, 2));
     }
 
     private static void notConcurrentWithItself(Checks due) {
         for (int replica = 0; replica < 3; replica++) {
-            due.no("areConcurrent with itself", new OfflineNotes().areConcurrent(replica, replica));
+            due.no("areConcurrent with itself", new Notes().areConcurrent(replica, replica));
         }
     }
 
@@ -227,7 +227,7 @@ final class ReplicaBoundaries {
 
     private static void differentStatesFrom1On(Checks due) {
         for (int count = 1; count <= 4; count++) {
-            OfflineNotes notes = Worlds.empty(count, 1, 1);
+            Notes notes = Worlds.empty(count, 1, 1);
             due.equal("differentStates of " + count + " empty ones", notes.differentStates(), 1);
             for (int replica = 0; replica < count; replica++) {
                 notes.addTag(replica, 0);
@@ -236,14 +236,14 @@ final class ReplicaBoundaries {
             notes.mergeAll();
             due.equal("differentStates of " + count + " merged ones", notes.differentStates(), 1);
         }
-        OfflineNotes pairs = Texts.loaded("replicas 4 0 0; add 0 a; merge 3 0; add 1 b; merge 2 1");
+        Notes pairs = Texts.loaded("replicas 4 0 0; add 0 a; merge 3 0; add 1 b; merge 2 1");
         due.equal("differentStates of two pairs", pairs.differentStates(), 2);
     }
 
     // ---- counters
 
     private static void valueOfAllReplicas(Checks due) {
-        OfflineNotes notes = Texts.loaded("replicas 4 4 0; inc 0 3 1; inc 1 3 2; inc 2 3 4; inc 3 3 8; dec 0 3 16; dec 1 3 32;"
+        Notes notes = Texts.loaded("replicas 4 4 0; inc 0 3 1; inc 1 3 2; inc 2 3 4; inc 3 3 8; dec 0 3 16; dec 1 3 32;"
                 + " dec 2 3 64; dec 3 3 99; inc 3 3 99");
         due.equal("counterValue before a merge", notes.counterValue(0, 3), 1 - 16);
         due.equal("counterValue of the last one", notes.counterValue(3, 3), 8);
@@ -252,7 +252,7 @@ final class ReplicaBoundaries {
             due.equal("counterValue of all", notes.counterValue(replica, 3), 15 - 112);
             due.equal("counterValue of another counter", notes.counterValue(replica, 2), 0);
         }
-        OfflineNotes crowded = Worlds.crowded();
+        Notes crowded = Worlds.crowded();
         for (int counter = 0; counter < 4; counter++) {
             int value = 4 * (50 + 10 * counter) + 6 - 4 * (1 + 8 * counter) - 12;
             due.equal("counterValue beside others", crowded.counterValue(3, counter), value);
@@ -260,7 +260,7 @@ final class ReplicaBoundaries {
     }
 
     private static void valuesAroundZero(Checks due) {
-        OfflineNotes notes = Worlds.empty(1, 1, 0);
+        Notes notes = Worlds.empty(1, 1, 0);
         due.equal("counterValue at first", notes.counterValue(0, 0), 0);
         notes.decrement(0, 0, 1);
         due.equal("counterValue of -1", notes.counterValue(0, 0), -1);
@@ -284,7 +284,7 @@ final class ReplicaBoundaries {
     }
 
     private static void incrementsFrom0On(Checks due) {
-        OfflineNotes notes = Texts.loaded("replicas 4 4 0; inc 3 3 1; merge 0 3; inc 3 3 99; dec 3 3 7");
+        Notes notes = Texts.loaded("replicas 4 4 0; inc 3 3 1; merge 0 3; inc 3 3 99; dec 3 3 7");
         due.equal("increments of none", notes.increments(1, 3, 3), 0);
         due.equal("increments that are known", notes.increments(0, 3, 3), 1);
         due.equal("increments of its own", notes.increments(3, 3, 3), 100);
@@ -299,7 +299,7 @@ final class ReplicaBoundaries {
     }
 
     private static void decrementsFrom0On(Checks due) {
-        OfflineNotes notes = Texts.loaded("replicas 4 4 0; dec 3 3 1; merge 0 3; dec 3 3 99; inc 3 3 7");
+        Notes notes = Texts.loaded("replicas 4 4 0; dec 3 3 1; merge 0 3; dec 3 3 99; inc 3 3 7");
         due.equal("decrements of none", notes.decrements(1, 3, 3), 0);
         due.equal("decrements that are known", notes.decrements(0, 3, 3), 1);
         due.equal("decrements of its own", notes.decrements(3, 3, 3), 100);

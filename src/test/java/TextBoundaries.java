@@ -81,13 +81,13 @@ final class TextBoundaries {
     /** Each row is a text and the error that it has. */
     private static void errors(Checks due, String[][] rows) {
         for (String[] row : rows) {
-            due.equal("the error of \"" + row[0] + "\"", Texts.error(new OfflineNotes(), row[0]), row[1]);
+            due.equal("the error of \"" + row[0] + "\"", Texts.error(new Notes(), row[0]), row[1]);
         }
     }
 
     private static void loads(Checks due, String... texts) {
         for (String text : texts) {
-            due.equal("the answer to \"" + text + "\"", Texts.error(new OfflineNotes(), text), "loaded 0@-1");
+            due.equal("the answer to \"" + text + "\"", Texts.error(new Notes(), text), "loaded 0@-1");
         }
     }
 
@@ -108,7 +108,7 @@ final class TextBoundaries {
         for (int replicas = 1; replicas <= 4; replicas++) {
             for (int counters = 0; counters <= 4; counters++) {
                 for (int registers = 0; registers <= 4; registers++) {
-                    OfflineNotes notes = Worlds.empty(replicas, counters, registers);
+                    Notes notes = Worlds.empty(replicas, counters, registers);
                     due.equal("the numbers", "" + notes.replicaCount() + notes.counterCount() + notes.registerCount(),
                             "" + replicas + counters + registers);
                 }
@@ -151,17 +151,17 @@ final class TextBoundaries {
     }
 
     private static void mergeOfTheSameOne(Checks due) {
-        OfflineNotes notes = Texts.loaded(HEAD + "add 0 a;add 1 b;write 1 0 5;merge 0 0;merge 1 1");
+        Notes notes = Texts.loaded(HEAD + "add 0 a;add 1 b;write 1 0 5;merge 0 0;merge 1 1");
         due.equal("merges of the same ones", Views.world(notes), Views.world(Texts.loaded(HEAD
                 + "add 0 a;add 1 b;write 1 0 5")));
-        OfflineNotes last = Texts.loaded("replicas 4 0 0;add 3 a;add 0 b;merge 0 3");
+        Notes last = Texts.loaded("replicas 4 0 0;add 3 a;add 0 b;merge 0 3");
         due.equal("the first one", Texts.tags(last, 0), "ab");
         due.equal("the second one", Texts.tags(last, 3), "a");
     }
 
     private static void deliverOfTheFirstAndTheLastMessage(Checks due) {
         String text = "replicas 4 0 0;add 0 a;send 0;add 0 b;send 0;send 0;send 0;send 0;add 0 c;send 0";
-        OfflineNotes notes = Texts.loaded(text + ";deliver 0 3;deliver 5 1;deliver 1 2");
+        Notes notes = Texts.loaded(text + ";deliver 0 3;deliver 5 1;deliver 1 2");
         due.equal("the first message", Texts.tags(notes, 3), "a");
         due.equal("the last message", Texts.tags(notes, 1), "abc");
         due.equal("the second message", Texts.tags(notes, 2), "ab");
@@ -199,7 +199,7 @@ final class TextBoundaries {
             {HEAD + "inc 0 0 0123456789", "1@23"}, {"replicasreplicas 1 1 1", "1@0"}, {HEAD + "addadd 1 a", "1@15"},
             {HEAD + "sendz 0", "1@15"}, {HEAD + "mergesend 0", "1@15"}, {HEAD + ";", "1@15"}});
         due.equal("a number of two digits", Texts.loaded(HEAD + "inc 0 0 98").counterValue(0, 0), 98);
-        due.equal("semicolons are tokens of one byte", Texts.error(new OfflineNotes(), HEAD + "add 1 a;;"), "1@23");
+        due.equal("semicolons are tokens of one byte", Texts.error(new Notes(), HEAD + "add 1 a;;"), "1@23");
     }
 
     private static void blanksBetweenTokens(Checks due) {
@@ -421,7 +421,7 @@ final class TextBoundaries {
     // ---- promises 4 and 5
 
     private static void lastKindIsTold(Checks due) {
-        OfflineNotes notes = new OfflineNotes();
+        Notes notes = new Notes();
         due.equal("a first error", Texts.error(notes, HEAD + "remove 0 a"), "3@24");
         notes.append(0, 0, 0, 0, 0);
         due.noIndex("load of too much", () -> notes.load(21));
@@ -440,7 +440,7 @@ final class TextBoundaries {
 
     private static void kind0AfterASuccess(Checks due) {
         for (String wrong : new String[] {"replicas", "replicas 0", HEAD + "remove 0 a", SIX + ";send 0"}) {
-            OfflineNotes notes = new OfflineNotes();
+            Notes notes = new Notes();
             Texts.error(notes, wrong);
             due.that("an error of \"" + wrong + "\"", notes.errorKind() != 0);
             Texts.load(notes, HEAD + "add 0 a");
@@ -449,7 +449,7 @@ final class TextBoundaries {
     }
 
     private static void kind0AtFirst(Checks due) {
-        OfflineNotes notes = new OfflineNotes();
+        Notes notes = new Notes();
         due.equal("the kind at first", notes.errorKind(), 0);
         notes.append(0, 0, 0, 0, 0);
         due.noIndex("load of too much", () -> notes.load(21));
@@ -457,7 +457,7 @@ final class TextBoundaries {
     }
 
     private static void lastOffsetIsTold(Checks due) {
-        OfflineNotes notes = new OfflineNotes();
+        Notes notes = new Notes();
         due.equal("a first error", Texts.error(notes, "replicas 2 1 x"), "1@13");
         due.noIndex("load of too much", () -> notes.load(1));
         due.equal("the offset after a refused length", notes.errorOffset(), 13);
@@ -471,7 +471,7 @@ final class TextBoundaries {
     }
 
     private static void offsetNone(Checks due) {
-        OfflineNotes notes = new OfflineNotes();
+        Notes notes = new Notes();
         due.equal("the offset at first", notes.errorOffset(), OfflineNotes.NONE);
         due.equal("an error", Texts.error(notes, "x"), "1@0");
         Texts.load(notes, HEAD + "add 0 a");

@@ -8,7 +8,7 @@ final class Texts {
     private Texts() {
     }
 
-    static void append(OfflineNotes notes, byte[] bytes) {
+    static void append(Notes notes, byte[] bytes) {
         for (int from = 0; from < bytes.length; from += 20) {
             notes.append(word(bytes, from), word(bytes, from + 4), word(bytes, from + 8), word(bytes, from + 12),
                     word(bytes, from + 16));
@@ -28,19 +28,19 @@ final class Texts {
         return text.getBytes(StandardCharsets.ISO_8859_1);
     }
 
-    static int load(OfflineNotes notes, String text) {
+    static int load(Notes notes, String text) {
         append(notes, bytes(text));
         return notes.load(text.length());
     }
 
-    static OfflineNotes loaded(String text) {
-        OfflineNotes notes = new OfflineNotes();
+    static Notes loaded(String text) {
+        Notes notes = new Notes();
         load(notes, text);
         return notes;
     }
 
     /** The error of a text, as kind@offset. */
-    static String error(OfflineNotes notes, String text) {
+    static String error(Notes notes, String text) {
         try {
             load(notes, text);
         } catch (IllegalArgumentException expected) {
@@ -49,7 +49,7 @@ final class Texts {
         return "loaded " + notes.errorKind() + "@" + notes.errorOffset();
     }
 
-    static String output(OfflineNotes notes, int length) {
+    static String output(Notes notes, int length) {
         StringBuilder text = new StringBuilder();
         for (int i = 0; i < length; i++) {
             text.append((char) notes.outputByte(i));
@@ -57,11 +57,11 @@ final class Texts {
         return text.toString();
     }
 
-    static String tags(OfflineNotes notes, int replica) {
+    static String tags(Notes notes, int replica) {
         return output(notes, notes.writeTags(replica));
     }
 
-    static String register(OfflineNotes notes, int replica, int register) {
+    static String register(Notes notes, int replica, int register) {
         return output(notes, notes.writeRegister(replica, register));
     }
 }

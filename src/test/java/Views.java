@@ -1,23 +1,27 @@
-/** What can be seen of an object, as texts to compare. */
+/** What can be seen of an object, as texts to compare. Others like it are asked, so the object stays as it is. */
 final class Views {
     private Views() {
     }
 
     /** All that tells one replica's state from another. */
-    static String state(OfflineNotes notes, int replica) {
+    static String state(Notes notes, int replica) {
+        Notes asked = notes.again();
+        int replicas = asked.replicaCount();
+        int counters = asked.counterCount();
+        int registers = asked.registerCount();
         StringBuilder text = new StringBuilder();
-        for (int by = 0; by < notes.replicaCount(); by++) {
-            text.append(notes.versionEntry(replica, by)).append(' ');
-            for (int counter = 0; counter < notes.counterCount(); counter++) {
-                text.append('+').append(notes.increments(replica, counter, by));
-                text.append('-').append(notes.decrements(replica, counter, by)).append(' ');
+        for (int by = 0; by < replicas; by++) {
+            text.append(asked.versionEntry(replica, by)).append(' ');
+            for (int counter = 0; counter < counters; counter++) {
+                text.append('+').append(asked.increments(replica, counter, by));
+                text.append('-').append(asked.decrements(replica, counter, by)).append(' ');
             }
             for (int tag = 0; tag < 16; tag++) {
-                int dot = notes.tagDot(replica, tag, by);
+                int dot = asked.tagDot(replica, tag, by);
                 text.append(dot == 0 ? "" : (char) ('a' + tag) + "" + dot + " ");
             }
-            for (int register = 0; register < notes.registerCount(); register++) {
-                text.append('=').append(notes.entryValue(replica, register, by)).append(' ');
+            for (int register = 0; register < registers; register++) {
+                text.append('=').append(asked.entryValue(replica, register, by)).append(' ');
             }
             text.append("; ");
         }
@@ -25,38 +29,43 @@ final class Views {
     }
 
     /** All replicas and messages, as far as they can be asked. */
-    static String world(OfflineNotes notes) {
+    static String world(Notes notes) {
+        Notes asked = notes.again();
+        int replicas = asked.replicaCount();
         StringBuilder text = new StringBuilder();
-        text.append(notes.replicaCount()).append(notes.counterCount()).append(notes.registerCount()).append('\n');
-        for (int replica = 0; replica < notes.replicaCount(); replica++) {
+        text.append(replicas).append(asked.counterCount()).append(asked.registerCount()).append('\n');
+        for (int replica = 0; replica < replicas; replica++) {
             text.append(state(notes, replica)).append('\n');
         }
-        for (int message = 0; message < notes.messageCount(); message++) {
-            text.append("from ").append(notes.senderOf(message));
-            for (int replica = 0; replica < notes.replicaCount(); replica++) {
-                text.append(notes.isNews(message, replica) ? " news" : " known");
+        int messages = asked.messageCount();
+        for (int message = 0; message < messages; message++) {
+            text.append("from ").append(asked.senderOf(message));
+            for (int replica = 0; replica < replicas; replica++) {
+                text.append(asked.isNews(message, replica) ? " news" : " known");
             }
             text.append('\n');
         }
         return text.toString();
     }
 
-    /** What each message brings to replica 0: changes are made and undone, so that an older one may be lost. */
-    static String messages(OfflineNotes notes) {
+    /** What each message brings to replica 0. */
+    static String messages(Notes notes) {
+        int count = notes.again().messageCount();
         StringBuilder text = new StringBuilder();
-        for (int message = 0; message < notes.messageCount(); message++) {
-            notes.deliver(message, 0);
-            text.append("message ").append(message).append(": ").append(state(notes, 0)).append('\n');
-            notes.undo();
+        for (int message = 0; message < count; message++) {
+            Notes getting = notes.again();
+            getting.deliver(message, 0);
+            text.append("message ").append(message).append(": ").append(state(getting, 0)).append('\n');
         }
         return text.toString();
     }
 
-    static String output(OfflineNotes notes) {
+    static String output(Notes notes) {
+        Notes asked = notes.again();
         StringBuilder text = new StringBuilder();
         try {
             for (int i = 0; i <= 100; i++) {
-                text.append((char) notes.outputByte(i));
+                text.append((char) asked.outputByte(i));
             }
         } catch (IndexOutOfBoundsException end) {
             return text.toString();
@@ -64,58 +73,62 @@ final class Views {
         return text + " and more";
     }
 
-    static String error(OfflineNotes notes) {
-        return notes.errorKind() + "@" + notes.errorOffset();
+    static String error(Notes notes) {
+        Notes asked = notes.again();
+        return asked.errorKind() + "@" + asked.errorOffset();
     }
 
-    /** Replicas, messages, output, recorded changes and saved states; the object is used up by it. */
-    static String allButInput(OfflineNotes notes) {
+    /** Replicas, messages, output, recorded changes and saved states. */
+    static String allButInput(Notes notes) {
         StringBuilder text = new StringBuilder();
-        text.append(world(notes)).append("output ").append(output(notes)).append('\n');
-        text.append(undone(notes)).append(messages(notes));
+        text.append(world(notes)).append(messages(notes)).append("output ").append(output(notes)).append('\n');
+        text.append(undone(notes));
         for (int slot = 0; slot < 2; slot++) {
             text.append(restored(notes, slot));
         }
         return text.toString();
     }
 
-    /** All that can be brought to light; the object is used up by it. */
-    static String everything(OfflineNotes notes) {
+    /** All that can be brought to light. */
+    static String everything(Notes notes) {
         return "error " + error(notes) + "\n" + allButInput(notes) + read(notes);
     }
 
-    private static String undone(OfflineNotes notes) {
+    private static String undone(Notes notes) {
+        Notes undoing = notes.again();
         StringBuilder text = new StringBuilder();
         try {
             for (int i = 0; i < 20; i++) {
-                text.append("undo ").append(notes.undo()).append('\n').append(world(notes));
+                text.append("undo ").append(undoing.undo()).append('\n').append(world(undoing));
             }
         } catch (IllegalStateException end) {
-            return text.toString();
+            return text + messages(undoing);
         }
         return text + "and more\n";
     }
 
-    private static String restored(OfflineNotes notes, int slot) {
+    private static String restored(Notes notes, int slot) {
+        Notes restoring = notes.again();
         try {
-            return "slot " + slot + ": " + notes.restore(slot) + "\n" + world(notes) + messages(notes);
+            return "slot " + slot + ": " + restoring.restore(slot) + "\n" + world(restoring) + messages(restoring);
         } catch (IllegalStateException empty) {
             return "slot " + slot + " is empty\n";
         }
     }
 
     /** The input buffer, by the answer to it as a text. */
-    private static String read(OfflineNotes notes) {
-        int length = inputLength(notes);
+    private static String read(Notes notes) {
+        Notes reading = notes.again();
+        int length = inputLength(reading);
         try {
-            return "input " + length + ": " + notes.load(length) + "\n" + world(notes);
+            return "input " + length + ": " + reading.load(length) + "\n" + world(reading);
         } catch (IllegalArgumentException error) {
-            return "input " + length + ": " + error(notes) + "\n";
+            return "input " + length + ": " + error(reading) + "\n";
         }
     }
 
     /** The length of the input, which grows by a row of spaces if there is room. */
-    private static int inputLength(OfflineNotes notes) {
+    private static int inputLength(Notes notes) {
         try {
             return notes.append(Texts.SPACES, Texts.SPACES, Texts.SPACES, Texts.SPACES, Texts.SPACES);
         } catch (IllegalStateException full) {

@@ -3,13 +3,13 @@ final class Worlds {
     private Worlds() {
     }
 
-    static OfflineNotes busy() {
+    static Notes busy() {
         return busy(3, 2, 2, 3);
     }
 
     /** The same as busyWithoutInput, with a text of 40 bytes in the input buffer. */
-    static OfflineNotes busy(int replicas, int counters, int registers, int messages) {
-        OfflineNotes notes = busyWithoutInput(replicas, counters, registers, messages);
+    static Notes busy(int replicas, int counters, int registers, int messages) {
+        Notes notes = busyWithoutInput(replicas, counters, registers, messages);
         Texts.append(notes, Texts.bytes("replicas 2 1 1;add 1 p; write 0 0 5     "));
         return notes;
     }
@@ -18,8 +18,8 @@ final class Worlds {
      * An object of which 10 changes can be undone (others are too old), whose slot 0 is empty and slot 1 is
      * not, with the error 2@11 reported and some output. Replica 0 has all tags, each replica has the tag a.
      */
-    static OfflineNotes busyWithoutInput(int replicas, int counters, int registers, int messages) {
-        OfflineNotes notes = Texts.loaded(text(replicas, counters, registers));
+    static Notes busyWithoutInput(int replicas, int counters, int registers, int messages) {
+        Notes notes = Texts.loaded(text(replicas, counters, registers));
         for (int replica = 0; replica < replicas; replica++) {
             for (int counter = 0; counter < counters; counter++) {
                 notes.increment(replica, counter, 10 + replica);
@@ -53,7 +53,7 @@ final class Worlds {
         return text.toString();
     }
 
-    private static void fillHistory(OfflineNotes notes) {
+    private static void fillHistory(Notes notes) {
         int last = notes.replicaCount() - 1;
         for (int i = 0; i < 6; i++) {
             notes.addTag(0, i);
@@ -62,13 +62,13 @@ final class Worlds {
     }
 
     /** An object with nothing but the numbers of replicas, counters and registers. */
-    static OfflineNotes empty(int replicas, int counters, int registers) {
+    static Notes empty(int replicas, int counters, int registers) {
         return Texts.loaded("replicas " + replicas + " " + counters + " " + registers);
     }
 
     /** As full, but each replica has counted with all counters, and all is merged: nothing is zero or absent. */
-    static OfflineNotes crowded() {
-        OfflineNotes notes = full();
+    static Notes crowded() {
+        Notes notes = full();
         for (int replica = 0; replica < 4; replica++) {
             for (int counter = 0; counter < 4; counter++) {
                 notes.increment(replica, counter, 50 + 10 * counter + replica);
@@ -80,8 +80,8 @@ final class Worlds {
     }
 
     /** Each of four replicas has added all tags and written all registers, and knows nothing of the others. */
-    static OfflineNotes full() {
-        OfflineNotes notes = empty(4, 4, 4);
+    static Notes full() {
+        Notes notes = empty(4, 4, 4);
         for (int replica = 0; replica < 4; replica++) {
             for (int tag = 0; tag < 16; tag++) {
                 notes.addTag(replica, tag);
