@@ -36,6 +36,7 @@ final class InputBoundaries {
         sentences.test(3, "Parses the first bytes of the input buffer as a description",
                 InputBoundaries::loadEndsAtLength);
         sentences.test(3, "replaces all replicas and messages by the result.", InputBoundaries::loadReplacesAll);
+        sentences.test(3, "replaces all replicas and messages", InputBoundaries::loadLeavesNothing);
         sentences.test(3, "The recorded changes", InputBoundaries::loadDiscardsChanges);
         sentences.test(3, "and the saved states are discarded.", InputBoundaries::loadDiscardsSavedStates);
         sentences.test(3, "The output buffer stays as it is.", InputBoundaries::loadLeavesTheOutput);
@@ -189,6 +190,19 @@ final class InputBoundaries {
         due.equal("all states are empty", notes.differentStates() * 100 + notes.deltaSize(0, 3) + notes.entryCount(0, 3), 100);
         due.equal("the first message", notes.send(3), 0);
         due.equal("what it brings", Views.messages(notes), "message 0: " + Views.state(notes, 3) + "\n");
+    }
+
+    /** An object may use its rows again, but nothing of an earlier world comes to light. */
+    private static void loadLeavesNothing(Checks due) {
+        Notes notes = Worlds.crowded();
+        for (int time = 1; time <= 4; time++) {
+            Texts.load(notes, "replicas 4 4 4");
+            due.equal("differentStates of an empty world", notes.differentStates(), 1);
+            due.equal("mergeAll of an empty world", notes.mergeAll(), 0);
+            due.equal("all of an empty world", Views.world(notes), Views.world(Worlds.empty(4, 4, 4)));
+            Texts.load(notes, "replicas 4 4 4;inc 3 3 9;dec 3 3 9;add 3 p;write 3 3 99;write 0 0 99;send 3;add 0 a;merge 3 0");
+            due.equal("mergeAll of another world", notes.mergeAll(), 3);
+        }
     }
 
     private static void loadDiscardsChanges(Checks due) {

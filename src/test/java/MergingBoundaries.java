@@ -355,6 +355,26 @@ final class MergingBoundaries {
         notes.decrement(3, 3, 99);
         notes.merge(1, 3);
         due.equal("a greater sum of decrements alone", notes.increments(1, 3, 3) * 1000 + notes.decrements(1, 3, 3), 6107);
+        for (int by = 0; by < 4; by++) {
+            for (int counter = 0; counter < 4; counter++) {
+                keepsGreaterSums(due, by, counter, "");
+                keepsGreaterSums(due, by, counter, ";add " + by + " a;add " + by + " b;add " + by + " c");
+            }
+        }
+    }
+
+    /** The source knows smaller sums, which are no dots, so it does not matter what dots it has seen. */
+    private static void keepsGreaterSums(Checks due, int by, int counter, String dots) {
+        String place = by + " " + counter;
+        int other = 3 - by;
+        Notes notes = Texts.loaded("replicas 4 4 0;inc " + place + " 1;dec " + place + " 1" + dots + ";merge " + other + " " + by
+                + ";inc " + place + " 1;dec " + place + " 2");
+        due.no("a merge of smaller sums", notes.merge(by, other));
+        due.equal("the greater increments", notes.increments(by, counter, by), 2);
+        due.equal("the greater decrements", notes.decrements(by, counter, by), 3);
+        due.yes("a merge of greater sums", notes.merge(other, by));
+        due.equal("the increments after it", notes.increments(other, counter, by), 2);
+        due.equal("the decrements after it", notes.decrements(other, counter, by), 3);
     }
 
     private static void liveInBoth(Checks due) {
